@@ -33,7 +33,8 @@ public final class WireHouse {
         TY_NAME = 5, TY_NAME_LEN = 6, TY_TEXT = 7, TY_TEXT_END = 8;
     private static final int F_NUMBER = 0, F_MODE = 1, F_KIND = 2, F_TYPE = 3, F_KEY = 4,
         F_ONE = 5, F_PLACE = 6, F_POINTER = 7, F_FLAG = 8, F_NAME = 9, F_NAME_LEN = 10,
-        F_DEFAULT = 11, F_DEFAULT_AT = 12, F_DEFAULT_LEN = 13, F_RANK = 14, F_ORDER = 15;
+        F_DEFAULT = 11, F_DEFAULT_AT = 12, F_DEFAULT_LEN = 13, F_RANK = 14, F_ORDER = 15,
+        F_TAG = 16;
     private static final int O_NAME = 0, O_NAME_LEN = 1, O_FIRST = 2, O_COUNT = 3, O_LEAST = 4;
     private static final int S_CALLS = 0, S_CELLS = 1, S_NAME = 2, S_NAME_LEN = 3, S_TEXT = 4,
         S_TEXT_END = 5;
@@ -135,6 +136,8 @@ public final class WireHouse {
     private final Tree work = new Tree(6000, 3 * ROOM), made = new Tree(MOST_VALUES + 2, ROOM);
     private final Bytes wire = new Bytes(4 * ROOM), body = new Bytes(4 * ROOM);
     private int latestPlace = NO;
+    /** The place of the latest fault of what was READ. */
+    private int wirePlace;
     private long latestNumber;
 
     public WireHouse() {
@@ -230,7 +233,7 @@ public final class WireHouse {
         if (!isRow(row) || i < 0 || i >= rows[row].n || mask < 0 || mask > 255) {
             return BAD;
         }
-        rows[row].put(i, rows[row].at(i) ^ mask);
+        rows[row].change(i, rows[row].at(i) ^ mask);
         return rows[row].at(i);
     }
 
@@ -494,16 +497,18 @@ public final class WireHouse {
 
     /** A row is READ into the work tree as a record of schema s: the fault. */
     private int takeWire(int s, int k, int format, Bytes row) {
+        int fault;
         work.begin(s, k);
         if (format == STREAM) {
-            serial.takeStream(schemas[s], work, row);
+            fault = serial.takeStream(schemas[s], work, row);
         } else if (format == LINEAR) {
-            serial.takeLinear(schemas[s], work, row);
+            fault = serial.takeLinear(schemas[s], work, row);
         } else {
-            slotted.takeSlotted(schemas[s], work, row);
-            return slotted.fault;
+            fault = slotted.takeSlotted(schemas[s], work, row);
         }
-        return serial.fault;
+        wirePlace = fault == 0 ? 0 : format <= LINEAR ? serial.place : slotted.place;
+        work.tally();
+        return fault == 0 && work.isLarge() ? 7 : fault;
     }
 
     public int encode(int m, int format, int row) {
@@ -527,7 +532,7 @@ public final class WireHouse {
             return BAD;
         }
         int fault = takeWire(s, k, format, rows[row]);
-        return finish(m, fault, format <= LINEAR ? serial.place : slotted.place, 7);
+        return finish(m, fault, wirePlace, 7);
     }
 
     // ---- paths
@@ -730,9 +735,11 @@ public final class WireHouse {
             }
         } else {
             int r = net.arriveAtClient();
-            if (r >= 0) {
-                accept(r, net.letters.at(LETTERS, L_TO));
+            int code = r < 0 ? 0 : (int) net.bodyAt(r).bigAt(4, 4);
+            if (r >= 0 && code == 0 && !takeAnswer(r, net.letters.at(LETTERS, L_TO))) {
+                code = 7;
             }
+            net.end(r, code == 0 ? ANSWERED : FAILED, code);
         }
         return net.letterCount;
     }
@@ -748,9 +755,13 @@ public final class WireHouse {
             code = 1;
         } else if (j < 0) {
             code = 2;
-        } else if (!takeMessage(s, sc.calls.at(net.service, j, C_IN), call, 16)) {
+        }
+        wire.empty();
+        wire.addAll(call, 16, call.n - 16);
+        if (code == 0 && takeWire(s, sc.calls.at(net.service, j, C_IN), net.format, wire) != 0) {
             code = 3;
-        } else {
+        }
+        if (code == 0) {
             made.begin(s, sc.calls.at(net.service, j, C_OUT));
             code = net.run(sc, j, work, made);
             if (code == 0 && (!giveWire(sc, made, net.format) || wire.isOver(ROOM - 8))) {
@@ -765,32 +776,15 @@ public final class WireHouse {
         net.reply(body);
     }
 
-    /** READS the message in a BODY into the work tree: whether it can be. */
-    private boolean takeMessage(int s, int k, Bytes from, int off) {
-        wire.empty();
-        wire.addAll(from, off, from.n - off);
-        if (takeWire(s, k, net.format, wire) != 0) {
-            return false;
-        }
-        work.tally();
-        return !work.isLarge();
-    }
-
-    /** A client has all of an answer to a call. */
-    private void accept(int r, int c) {
-        Bytes answer = net.bodyAt(r);
-        int code = (int) answer.bigAt(4, 4);
-        if (code == 0 && !takeAnswer(r, c)) {
-            code = 7;
-        }
-        net.end(r, code == 0 ? ANSWERED : FAILED, code);
-    }
-
+    /** READS an answer to a client's call into the work tree: whether it can be. */
     private boolean takeAnswer(int r, int c) {
         int s = clientSchema(c);
         int j = net.calls.at(r, K_PLACE);
+        Bytes answer = net.bodyAt(r);
+        wire.empty();
+        wire.addAll(answer, 8, answer.n - 8);
         int k = schemas[s].calls.at(net.clients.at(c, CL_SERVICE), j, C_OUT);
-        return takeMessage(s, k, net.bodyAt(r), 8);
+        return takeWire(s, k, net.format, wire) == 0;
     }
 
     public int lose(int i) {
@@ -973,7 +967,7 @@ public final class WireHouse {
             }
         }
 
-        void put(int i, int b) {
+        void change(int i, int b) {
             if (i >= 0 && i < n && i < data.length) {
                 data[i] = (byte) b;
             }
@@ -984,8 +978,14 @@ public final class WireHouse {
         }
 
         void addAll(Bytes from, int off, int len) {
-            for (int i = 0; i < len; i++) {
-                add(from.at(off + i));
+            for (int i = off; i < off + len; i++) {
+                boolean given = i >= 0 && i < from.n && i < from.data.length;
+                if (n >= 0 && n < data.length) {
+                    data[n] = given ? from.data[i] : 0;
+                    n++;
+                } else {
+                    lost++;
+                }
             }
         }
 
@@ -1001,13 +1001,18 @@ public final class WireHouse {
             }
             n = Math.max(n, place + len);
             for (int i = 0; i < len; i++) {
-                put(place + i, from.at(off + i));
+                change(place + i, from.at(off + i));
             }
         }
 
         void addBig(long v, int count) {
             for (int i = count - 1; i >= 0; i--) {
-                add((int) (v >>> 8 * i));
+                if (n >= 0 && n < data.length) {
+                    data[n] = (byte) (v >>> 8 * i);
+                    n++;
+                } else {
+                    lost++;
+                }
             }
         }
 
@@ -1019,16 +1024,16 @@ public final class WireHouse {
 
         long bigAt(int i, int count) {
             long v = 0;
-            for (int b = 0; b < count; b++) {
-                v = v << 8 | at(i + b);
+            for (int k = i; k < i + count; k++) {
+                v = v << 8 | (k >= 0 && k < n && k < data.length ? data[k] & 255 : 0);
             }
             return v;
         }
 
         long littleAt(int i, int count) {
             long v = 0;
-            for (int b = count - 1; b >= 0; b--) {
-                v = v << 8 | at(i + b);
+            for (int k = i + count - 1; k >= i; k--) {
+                v = v << 8 | (k >= 0 && k < n && k < data.length ? data[k] & 255 : 0);
             }
             return v;
         }
@@ -1053,22 +1058,32 @@ public final class WireHouse {
                 add(0);
             }
             for (int i = n - 1; i >= start + more; i--) {
-                put(i, at(i - more));
+                change(i, at(i - more));
             }
             for (int i = 0; i < more; i++) {
-                put(start + i, len >>> 7 * i & 127 | (i + 1 < more ? 128 : 0));
+                change(start + i, len >>> 7 * i & 127 | (i + 1 < more ? 128 : 0));
             }
         }
 
         boolean matches(int off, int len, Bytes other, int otherOff, int otherLen) {
-            return len == otherLen && compareAt(off, len, other, otherOff, otherLen) == 0;
+            for (int i = 0; i < len && len == otherLen; i++) {
+                int x = off + i;
+                int y = otherOff + i;
+                boolean inside = x >= 0 && y >= 0 && x < data.length && y < other.data.length;
+                if (!inside || data[x] != other.data[y]) {
+                    return false;
+                }
+            }
+            return len == otherLen;
         }
 
-        int compareAt(int off, int len, Bytes other, int otherOff, int otherLen) {
+        int compareAt(int off, int len, int otherOff, int otherLen) {
             for (int i = 0; i < len && i < otherLen; i++) {
-                int by = at(off + i) - other.at(otherOff + i);
-                if (by != 0) {
-                    return by;
+                int x = off + i;
+                int y = otherOff + i;
+                boolean inside = x >= 0 && y >= 0 && x < data.length && y < data.length;
+                if (inside && data[x] != data[y]) {
+                    return (data[x] & 255) - (data[y] & 255);
                 }
             }
             return len - otherLen;
@@ -1089,15 +1104,15 @@ public final class WireHouse {
 
         /** How many bytes the UTF-8 sign at a place has, 0 if none stands there. */
         private int signLength(int i, int end) {
-            int a = at(i);
+            int a = i >= 0 && i < n && i < data.length ? data[i] & 255 : 0;
             int size = a < 128 ? 1 : a < 194 ? 0 : a < 224 ? 2 : a < 240 ? 3 : a < 245 ? 4 : 0;
-            if (size == 0 || i + size > end) {
+            if (size == 0 || i < 0 || i + size > end) {
                 return 0;
             }
             int least = a == 224 ? 160 : a == 240 ? 144 : 128;
             int most = a == 237 ? 159 : a == 244 ? 143 : 191;
             for (int k = 1; k < size; k++) {
-                int b = at(i + k);
+                int b = i + k < data.length ? data[i + k] & 255 : 0;
                 if (b < (k == 1 ? least : 128) || b > (k == 1 ? most : 191)) {
                     return 0;
                 }
@@ -1111,7 +1126,9 @@ public final class WireHouse {
         private static final int MOST = 4002;
         private static final String SIGNS = "{}()[]<>,;:=@.+-*/%!";
         private final int[] kinds = new int[MOST], spots = new int[MOST];
-        private final int[] canons = new int[MOST], lengths = new int[MOST];
+        /** Where tokens stand WRITTEN OUT; of a NAME where it stands first. */
+        private final int[] firsts = new int[MOST], lengths = new int[MOST];
+        private final int[] starts = new int[MOST];
         private final int[] stringAts = new int[MOST], stringLens = new int[MOST];
         private final long[] values = new long[MOST];
         /** The tokens as WRITTEN OUT, a blank behind each, and the bytes that STRINGS mean. */
@@ -1156,8 +1173,14 @@ public final class WireHouse {
             return token >= 0 && token < MOST ? spots[token] : 0;
         }
 
-        int canonOf(int token) {
-            return token >= 0 && token < MOST ? canons[token] : 0;
+        /** Where a token stands WRITTEN OUT. */
+        int startOf(int token) {
+            return token >= 0 && token < MOST ? starts[token] : 0;
+        }
+
+        /** Where a NAME stands WRITTEN OUT first: the same NAMES have the same place. */
+        int nameOf(int token) {
+            return token >= 0 && token < MOST ? firsts[token] : 0;
         }
 
         int lengthOf(int token) {
@@ -1174,11 +1197,6 @@ public final class WireHouse {
 
         long valueOf(int token) {
             return token >= 0 && token < MOST ? values[token] : 0;
-        }
-
-        /** Whether a token's bytes are those at a place of a text. */
-        boolean spells(int token, Bytes other, int off, int len) {
-            return canon.matches(canonOf(token), lengthOf(token), other, off, len);
         }
 
         private int behindBlanks(int from) {
@@ -1227,7 +1245,8 @@ public final class WireHouse {
             }
             kinds[count] = kindHere;
             spots[count] = at;
-            canons[count] = canon.n;
+            firsts[count] = canon.n;
+            starts[count] = canon.n;
             int from = at;
             // NUMBERS are WRITTEN OUT without 0s in front
             while (kindHere == T_NUMBER && from + 1 < end && text.at(from) == '0') {
@@ -1251,7 +1270,22 @@ public final class WireHouse {
             }
             int word = wordOf(at, end);
             keepToken(word >= 0 ? W_ENUM + word : T_NAME, at, end);
+            if (word < 0) {
+                findFirst();
+            }
             return end;
+        }
+
+        /** The latest token is a NAME, which may stand further ahead, too. */
+        private void findFirst() {
+            int latest = count - 1;
+            for (int i = 0; i < latest && latest < MOST; i++) {
+                if (kinds[i] == T_NAME && lengths[i] == lengths[latest]
+                        && canon.matches(starts[i], lengths[i], canon, starts[latest], lengths[i])) {
+                    firsts[latest] = firsts[i];
+                    return;
+                }
+            }
         }
 
         private int numberEnd(int at) {
@@ -1363,7 +1397,7 @@ public final class WireHouse {
             CELLS_EACH = 8, NODES_EACH = 100, WORDS_EACH = 64;
         final Table types = new Table(1, TYPES, 9);
         /** Fields of records, and constants of enums. */
-        final Table fields = new Table(TYPES, FIELDS, 16);
+        final Table fields = new Table(TYPES, FIELDS, 17);
         final Table ones = new Table(TYPES, ONES, 5);
         final Table services = new Table(1, SERVICES, 6);
         final Table calls = new Table(SERVICES, CALLS_EACH, 8);
@@ -1398,19 +1432,19 @@ public final class WireHouse {
         }
 
         int fieldCount(int k) {
-            return k >= 0 && k < typeCount ? types.at(k, TY_COUNT) : 0;
+            return types.at(k, TY_COUNT);
         }
 
         int oneCount(int k) {
-            return k >= 0 && k < typeCount ? types.at(k, TY_ONES) : 0;
+            return types.at(k, TY_ONES);
         }
 
         int callCount(int v) {
-            return v >= 0 && v < serviceCount ? services.at(v, S_CALLS) : 0;
+            return services.at(v, S_CALLS);
         }
 
         int cellCount(int v) {
-            return v >= 0 && v < serviceCount ? services.at(v, S_CELLS) : 0;
+            return services.at(v, S_CELLS);
         }
 
         /** Whether a field always has a value, with a DEFAULT. */
@@ -1424,21 +1458,22 @@ public final class WireHouse {
             return fields.at(k, j, F_MODE) <= MAYBE && fields.at(k, j, F_KIND) == RECORD;
         }
 
-        /** The type of a token's NAME, -1 without one. */
-        int typeNamed(Lexer lexer, int token) {
+        /** The type of a NAME, which stands at a place of another text; -1 without one. */
+        int typeNamed(Bytes names, int off, int len) {
             for (int k = 0; k < typeCount; k++) {
-                if (lexer.spells(token, text, types.at(k, TY_NAME), types.at(k, TY_NAME_LEN))) {
+                if (text.matches(types.at(k, TY_NAME), types.at(k, TY_NAME_LEN), names, off, len)) {
                     return k;
                 }
             }
             return -1;
         }
 
-        /** The field or constant of a token's NAME, -1 without one. */
-        int fieldNamed(int k, Lexer lexer, int token) {
-            for (int j = 0; j < fieldCount(k); j++) {
+        /** The field or constant of a NAME, which stands at a place of another text, or -1. */
+        int fieldNamed(int k, Bytes names, int off, int len) {
+            int count = types.at(k, TY_COUNT);
+            for (int j = 0; j < count; j++) {
                 int name = fields.at(k, j, F_NAME);
-                if (lexer.spells(token, text, name, fields.at(k, j, F_NAME_LEN))) {
+                if (text.matches(name, fields.at(k, j, F_NAME_LEN), names, off, len)) {
                     return j;
                 }
             }
@@ -1447,7 +1482,8 @@ public final class WireHouse {
 
         /** The field or constant of a number, -1 without one. */
         int numbered(int k, long number) {
-            for (int j = 0; j < fieldCount(k); j++) {
+            int count = types.at(k, TY_COUNT);
+            for (int j = 0; j < count; j++) {
                 if (fields.num(k, j, F_NUMBER) == number) {
                     return j;
                 }
@@ -1456,7 +1492,8 @@ public final class WireHouse {
         }
 
         int callNumbered(int v, int number) {
-            for (int j = 0; j < callCount(v); j++) {
+            int count = services.at(v, S_CALLS);
+            for (int j = 0; j < count; j++) {
                 if (calls.at(v, j, C_NUMBER) == number) {
                     return j;
                 }
@@ -1533,6 +1570,11 @@ public final class WireHouse {
             int pointer = others ? nextPointer(k) : NO;
             for (int j = first; j < behind; j++) {
                 boolean number = isNumber(fields.at(k, j, F_KIND));
+                int before = 0;
+                for (int i = first; i < behind; i++) {
+                    before += fields.at(k, i, F_NUMBER) < fields.at(k, j, F_NUMBER) ? 1 : 0;
+                }
+                fields.set(k, j, F_TAG, before + 1);
                 fields.set(k, j, F_FLAG, tag);
                 fields.set(k, j, F_PLACE, number ? place : NO);
                 fields.set(k, j, F_POINTER, number ? NO : pointer);
@@ -1555,19 +1597,6 @@ public final class WireHouse {
                 }
             }
             return NO;
-        }
-
-        /** Which of a one's fields by rising numbers a field is, from 1 on. */
-        int tagOf(int k, int j) {
-            int one = fields.at(k, j, F_ONE);
-            int first = ones.at(k, one, O_FIRST);
-            int tag = 1;
-            for (int i = first; i < first + ones.at(k, one, O_COUNT); i++) {
-                if (fields.at(k, i, F_NUMBER) < fields.at(k, j, F_NUMBER)) {
-                    tag++;
-                }
-            }
-            return tag;
         }
 
         /** THE MARK of bytes, going on from that of bytes before. */
@@ -1729,42 +1758,61 @@ public final class WireHouse {
                 fail(3);
                 return;
             }
-            if (isItemTold()) {
+            if (isItemTold(lexer.now)) {
                 later(4, lexer.spot);
             }
             sc.typeCount++;
             sc.types.set(k, TY_SORT, record ? 1 : 0);
-            sc.types.set(k, TY_NAME, lexer.canonOf(lexer.now));
+            sc.types.set(k, TY_NAME, lexer.nameOf(lexer.now));
             sc.types.set(k, TY_NAME_LEN, lexer.lengthOf(lexer.now));
-            sc.types.set(k, TY_TEXT, lexer.canonOf(lexer.now - 1));
+            sc.types.set(k, TY_TEXT, lexer.startOf(lexer.now - 1));
             lexer.step();
             expect('{');
-            if (record) {
-                recordParts(k);
-            } else {
-                constants(k);
+            boolean more = !record || lexer.kind != '}';
+            for (int turn = 0; turn < TURNS && fault == 0 && more; turn++) {
+                if (!record) {
+                    constant(k);
+                } else if (lexer.kind == W_ONE) {
+                    onePart(k);
+                } else if (lexer.kind == W_KEEP) {
+                    keepPart(k);
+                } else {
+                    fieldPart(k, NO);
+                }
+                more = record ? lexer.kind != '}' : lexer.kind == T_NAME;
             }
-            sc.types.set(k, TY_TEXT_END, lexer.canonOf(lexer.now) + 2);
+            sc.types.set(k, TY_TEXT_END, lexer.startOf(lexer.now) + 2);
             expect('}');
         }
 
-        private boolean isItemTold() {
+        /** The type of a token's NAME, -1 without one. */
+        private int typeNamed(int token) {
+            for (int k = 0; k < sc.typeCount; k++) {
+                if (sc.types.at(k, TY_NAME) == lexer.nameOf(token)) {
+                    return k;
+                }
+            }
+            return -1;
+        }
+
+        /** The field or constant of a token's NAME, -1 without one. */
+        private int fieldNamed(int k, int token) {
+            int count = sc.types.at(k, TY_COUNT);
+            for (int j = 0; j < count; j++) {
+                if (sc.fields.at(k, j, F_NAME) == lexer.nameOf(token)) {
+                    return j;
+                }
+            }
+            return -1;
+        }
+
+        private boolean isItemTold(int token) {
             for (int v = 0; v < sc.serviceCount; v++) {
-                int name = sc.services.at(v, S_NAME);
-                if (lexer.spells(lexer.now, sc.text, name, sc.services.at(v, S_NAME_LEN))) {
+                if (sc.services.at(v, S_NAME) == lexer.nameOf(token)) {
                     return true;
                 }
             }
-            return sc.typeNamed(lexer, lexer.now) >= 0;
-        }
-
-        private void constants(int k) {
-            for (int turn = 0; turn < TURNS && fault == 0; turn++) {
-                constant(k);
-                if (lexer.kind != T_NAME) {
-                    return;
-                }
-            }
+            return typeNamed(token) >= 0;
         }
 
         private void constant(int k) {
@@ -1777,7 +1825,7 @@ public final class WireHouse {
                 fail(3);
                 return;
             }
-            if (sc.fieldNamed(k, lexer, lexer.now) >= 0) {
+            if (fieldNamed(k, lexer.now) >= 0) {
                 later(4, lexer.spot);
             }
             nameField(k, j);
@@ -1798,7 +1846,7 @@ public final class WireHouse {
         }
 
         private void nameField(int k, int j) {
-            sc.fields.set(k, j, F_NAME, lexer.canonOf(lexer.now));
+            sc.fields.set(k, j, F_NAME, lexer.nameOf(lexer.now));
             sc.fields.set(k, j, F_NAME_LEN, lexer.lengthOf(lexer.now));
             sc.types.set(k, TY_COUNT, j + 1);
         }
@@ -1824,26 +1872,20 @@ public final class WireHouse {
             return below ? -lexer.valueOf(token + 1) : lexer.valueOf(token);
         }
 
-        private void recordParts(int k) {
-            for (int turn = 0; turn < TURNS && fault == 0 && lexer.kind != '}'; turn++) {
-                if (lexer.kind == W_ONE) {
-                    onePart(k);
-                } else if (lexer.kind == W_KEEP) {
-                    keepPart(k);
-                } else {
-                    field(k, NO);
-                }
-            }
-        }
-
-        private boolean isPartTold(int k) {
-            for (int o = 0; o < sc.oneCount(k); o++) {
-                int name = sc.ones.at(k, o, O_NAME);
-                if (lexer.spells(lexer.now, sc.text, name, sc.ones.at(k, o, O_NAME_LEN))) {
+        private boolean isPartTold(int k, int token) {
+            int count = sc.types.at(k, TY_ONES);
+            for (int o = 0; o < count; o++) {
+                if (sc.ones.at(k, o, O_NAME) == lexer.nameOf(token)) {
                     return true;
                 }
             }
-            return sc.fieldNamed(k, lexer, lexer.now) >= 0;
+            int fields = sc.types.at(k, TY_COUNT);
+            for (int j = 0; j < fields; j++) {
+                if (sc.fields.at(k, j, F_NAME) == lexer.nameOf(token)) {
+                    return true;
+                }
+            }
+            return false;
         }
 
         private void onePart(int k) {
@@ -1857,17 +1899,17 @@ public final class WireHouse {
                 fail(3);
                 return;
             }
-            if (isPartTold(k)) {
+            if (isPartTold(k, lexer.now)) {
                 later(4, lexer.spot);
             }
-            sc.ones.set(k, o, O_NAME, lexer.canonOf(lexer.now));
+            sc.ones.set(k, o, O_NAME, lexer.nameOf(lexer.now));
             sc.ones.set(k, o, O_NAME_LEN, lexer.lengthOf(lexer.now));
             sc.ones.set(k, o, O_FIRST, sc.fieldCount(k));
             sc.types.set(k, TY_ONES, o + 1);
             lexer.step();
             expect('{');
             for (int turn = 0; turn < TURNS && fault == 0; turn++) {
-                field(k, o);
+                fieldPart(k, o);
                 if (lexer.kind == '}') {
                     break;
                 }
@@ -1912,7 +1954,7 @@ public final class WireHouse {
             return number;
         }
 
-        private void field(int k, int one) {
+        private void fieldPart(int k, int one) {
             int mode = SINGLE;
             if (lexer.kind == W_MANY || lexer.kind == W_MAYBE) {
                 mode = lexer.kind == W_MANY ? MANY : MAYBE;
@@ -1971,7 +2013,7 @@ public final class WireHouse {
             } else if (j >= Schema.FIELDS) {
                 fail(3);
             } else {
-                if (isPartTold(k)) {
+                if (isPartTold(k, lexer.now)) {
                     later(4, lexer.spot);
                 }
                 nameField(k, j);
@@ -1989,7 +2031,8 @@ public final class WireHouse {
             int kind = lexer.kind;
             int token = lexer.now + 1;
             if (kind == '-') {
-                integer();
+                lexer.step();
+                expect(T_NUMBER);
             } else if (kind == T_NUMBER || kind == T_STRING || kind == T_NAME || kind == W_TRUE
                     || kind == W_FALSE) {
                 lexer.step();
@@ -2010,13 +2053,13 @@ public final class WireHouse {
                 fail(3);
                 return;
             }
-            if (isItemTold()) {
+            if (isItemTold(lexer.now)) {
                 later(4, lexer.spot);
             }
             sc.serviceCount++;
-            sc.services.set(v, S_NAME, lexer.canonOf(lexer.now));
+            sc.services.set(v, S_NAME, lexer.nameOf(lexer.now));
             sc.services.set(v, S_NAME_LEN, lexer.lengthOf(lexer.now));
-            sc.services.set(v, S_TEXT, lexer.canonOf(lexer.now - 1));
+            sc.services.set(v, S_TEXT, lexer.startOf(lexer.now - 1));
             lexer.step();
             expect('{');
             for (int turn = 0; turn < TURNS && fault == 0 && lexer.kind == W_CELL; turn++) {
@@ -2025,23 +2068,22 @@ public final class WireHouse {
             for (int turn = 0; turn < TURNS && fault == 0 && lexer.kind == W_CALL; turn++) {
                 callPart(v);
             }
-            sc.services.set(v, S_TEXT_END, lexer.canonOf(lexer.now) + 2);
+            sc.services.set(v, S_TEXT_END, lexer.startOf(lexer.now) + 2);
             expect('}');
         }
 
-        private boolean isServicePartTold(int v) {
+        private boolean isServicePartTold(int v, int token) {
             for (int j = 0; j < sc.callCount(v); j++) {
-                int name = sc.calls.at(v, j, C_NAME);
-                if (lexer.spells(lexer.now, sc.text, name, sc.calls.at(v, j, C_NAME_LEN))) {
+                if (sc.calls.at(v, j, C_NAME) == lexer.nameOf(token)) {
                     return true;
                 }
             }
-            return cellNamed(v, lexer.now) >= 0;
+            return cellNamed(v, token) >= 0;
         }
 
         private int cellNamed(int v, int token) {
             for (int i = 0; i < sc.cellCount(v); i++) {
-                if (lexer.spells(token, sc.text, sc.cells.at(v, i, 0), sc.cells.at(v, i, 1))) {
+                if (sc.cells.at(v, i, 0) == lexer.nameOf(token)) {
                     return i;
                 }
             }
@@ -2059,10 +2101,10 @@ public final class WireHouse {
                 fail(3);
                 return;
             }
-            if (isServicePartTold(v)) {
+            if (isServicePartTold(v, lexer.now)) {
                 later(4, lexer.spot);
             }
-            sc.cells.set(v, i, 0, lexer.canonOf(lexer.now));
+            sc.cells.set(v, i, 0, lexer.nameOf(lexer.now));
             sc.cells.set(v, i, 1, lexer.lengthOf(lexer.now));
             sc.services.set(v, S_CELLS, i + 1);
             lexer.step();
@@ -2080,10 +2122,10 @@ public final class WireHouse {
                 fail(3);
                 return;
             }
-            if (isServicePartTold(v)) {
+            if (isServicePartTold(v, lexer.now)) {
                 later(4, lexer.spot);
             }
-            sc.calls.set(v, j, C_NAME, lexer.canonOf(lexer.now));
+            sc.calls.set(v, j, C_NAME, lexer.nameOf(lexer.now));
             sc.calls.set(v, j, C_NAME_LEN, lexer.lengthOf(lexer.now));
             sc.services.set(v, S_CALLS, j + 1);
             lexer.step();
@@ -2242,18 +2284,12 @@ public final class WireHouse {
                     keepNode(kind == T_NUMBER ? OP_NUMBER : OP_CELL, lexer.valueOf(token), token);
                     lexer.step();
                 }
-            } else if (kind == W_IN) {
-                inNode();
-            } else {
+            } else if (kind != W_IN) {
                 refuse();
-            }
-        }
-
-        private void inNode() {
-            if (isNodeFree()) {
+            } else if (isNodeFree()) {
                 lexer.step();
                 expect('.');
-                int token = lexer.now;
+                token = lexer.now;
                 expect(T_NAME);
                 keepNode(OP_IN, 0, token);
             }
@@ -2278,7 +2314,7 @@ public final class WireHouse {
             if (word >= W_BOOL && word <= W_BYTES) {
                 return word - W_BOOL;
             }
-            int k = sc.typeNamed(lexer, token);
+            int k = typeNamed(token);
             return k < 0 ? -1 : sc.isRecord(k) ? RECORD : ENUM;
         }
 
@@ -2289,7 +2325,7 @@ public final class WireHouse {
                 later(5, lexer.spotOf(token));
             }
             sc.fields.set(k, j, F_KIND, kind);
-            sc.fields.set(k, j, F_TYPE, kind >= ENUM ? sc.typeNamed(lexer, token) : NO);
+            sc.fields.set(k, j, F_TYPE, kind >= ENUM ? typeNamed(token) : NO);
             sc.fields.set(k, j, F_KEY, NO);
             if (sc.fields.at(k, j, F_MODE) == MAP) {
                 int keyToken = told.at(k, j, TOKEN_KEY) - 1;
@@ -2316,7 +2352,7 @@ public final class WireHouse {
             int word = lexer.kindOf(token);
             boolean right = sc.isPlain(k, j);
             if (right && kind == ENUM && word == T_NAME) {
-                int constant = sc.fieldNamed(type, lexer, token);
+                int constant = fieldNamed(type, token);
                 if (constant < 0) {
                     later(5, lexer.spotOf(token));
                 }
@@ -2363,7 +2399,7 @@ public final class WireHouse {
         }
 
         private int recordAt(int token) {
-            int k = sc.typeNamed(lexer, token);
+            int k = typeNamed(token);
             if (!sc.isRecord(k)) {
                 later(5, lexer.spotOf(token));
                 return -1;
@@ -2377,7 +2413,7 @@ public final class WireHouse {
             if (sort == STEP_FAIL) {
                 return;
             }
-            int target = sort == STEP_CELL ? cellNamed(v, token) : sc.fieldNamed(out, lexer, token);
+            int target = sort == STEP_CELL ? cellNamed(v, token) : fieldNamed(out, token);
             if (target < 0) {
                 later(5, lexer.spotOf(token));
             } else if (sort == STEP_OUT && !(sc.fields.at(out, target, F_MODE) <= MAYBE
@@ -2392,7 +2428,7 @@ public final class WireHouse {
                 int op = sc.nodes.at(i, N_OP);
                 int token = nodeTokens.at(i, 0);
                 if (op == OP_CELL || op == OP_IN) {
-                    int found = op == OP_CELL ? cellNamed(v, token) : sc.fieldNamed(in, lexer, token);
+                    int found = op == OP_CELL ? cellNamed(v, token) : fieldNamed(in, token);
                     if (found < 0) {
                         later(5, lexer.spotOf(token));
                     }
@@ -2423,12 +2459,15 @@ public final class WireHouse {
         }
 
         void begin(int s, int k) {
-            used = ROOT;
+            for (int n = 0; n < used; n++) {
+                nodes.wipe(n);
+            }
+            used = ROOT + 1;
             cramped = false;
             pool.empty();
             schema = s;
             type = k;
-            nodes.set(fresh(), SHAPE, A_RECORD);
+            nodes.set(ROOT, SHAPE, A_RECORD);
         }
 
         int fresh() {
@@ -2436,7 +2475,6 @@ public final class WireHouse {
                 cramped = true;
                 return 0;
             }
-            nodes.wipe(used);
             used++;
             return used - 1;
         }
@@ -2503,6 +2541,24 @@ public final class WireHouse {
             return come;
         }
 
+        /** A record's field is not SET any more. */
+        void leave(int rec, int tag) {
+            int before = 0;
+            int n = nodes.at(rec, HEAD);
+            while (n != 0 && nodes.at(n, TAG) < tag) {
+                before = n;
+                n = nodes.at(n, NEXT);
+            }
+            if (n == 0 || nodes.at(n, TAG) != tag) {
+                return;
+            }
+            int after = nodes.at(n, NEXT);
+            nodes.set(before != 0 ? before : rec, before != 0 ? NEXT : HEAD, after);
+            if (after == 0) {
+                nodes.set(rec, TAIL, before);
+            }
+        }
+
         void unlink(int parent, int node) {
             int before = 0;
             int n = nodes.at(parent, HEAD);
@@ -2536,7 +2592,7 @@ public final class WireHouse {
             for (int i = 0; one >= 0 && i < sc.ones.at(k, one, O_COUNT); i++) {
                 int other = sc.ones.at(k, one, O_FIRST) + i;
                 if (other != j) {
-                    unlink(rec, fieldNode(sc, k, other, rec));
+                    leave(rec, sc.fields.at(k, other, F_RANK));
                 }
             }
             int n = enter(rec, sc.fields.at(k, j, F_RANK));
@@ -2548,7 +2604,8 @@ public final class WireHouse {
 
         /** A field that has its DEFAULT, or no item, is not SET. */
         void settle(Schema sc, int k, int j, int rec) {
-            int n = fieldNode(sc, k, j, rec);
+            int rank = sc.fields.at(k, j, F_RANK);
+            int n = child(rec, rank);
             int shape = nodes.at(n, SHAPE);
             boolean gone = false;
             if (shape == A_LIST || shape == A_MAP) {
@@ -2561,7 +2618,7 @@ public final class WireHouse {
                     sc.fields.at(k, j, F_DEFAULT_LEN));
             }
             if (gone) {
-                unlink(rec, n);
+                leave(rec, rank);
             }
         }
 
@@ -2574,6 +2631,15 @@ public final class WireHouse {
             nodes.set(node, OFF, pool.n);
             nodes.set(node, LEN, len);
             pool.addAll(from, off, len);
+        }
+
+        /** Keeps an unknown field with a record. */
+        void addStranger(int rec, long key, Bytes from, int off, int len) {
+            int n = append(rec);
+            nodes.set(n, TAG, STRANGER);
+            nodes.set(n, SHAPE, A_STRANGER);
+            nodes.set(n, NUM, key);
+            setString(n, from, off, len);
         }
 
         /** A node becomes one without anything, of the shape of a kind. */
@@ -2625,7 +2691,7 @@ public final class WireHouse {
 
         private int compareKey(int n, int keyKind, int keyNode) {
             if (keyKind == TEXT) {
-                return pool.compareAt(nodes.at(n, KEY_OFF), nodes.at(n, KEY_LEN), pool,
+                return pool.compareAt(nodes.at(n, KEY_OFF), nodes.at(n, KEY_LEN),
                     nodes.at(keyNode, OFF), nodes.at(keyNode, LEN));
             }
             return compareNumbers(keyKind, nodes.num(n, KEY), nodes.num(keyNode, NUM));
@@ -2634,7 +2700,7 @@ public final class WireHouse {
         /** Whether the value of one node is below that of another, as keys of a kind. */
         boolean isBelow(int one, int two, int keyKind) {
             if (keyKind == TEXT) {
-                return pool.compareAt(nodes.at(one, OFF), nodes.at(one, LEN), pool,
+                return pool.compareAt(nodes.at(one, OFF), nodes.at(one, LEN),
                     nodes.at(two, OFF), nodes.at(two, LEN)) < 0;
             }
             return compareNumbers(keyKind, nodes.num(one, NUM), nodes.num(two, NUM)) < 0;
@@ -2786,7 +2852,7 @@ public final class WireHouse {
                 refuse();
                 return;
             }
-            int k = sc.typeNamed(lexer, lexer.now);
+            int k = sc.typeNamed(lexer.canon, lexer.startOf(lexer.now), lexer.lengthOf(lexer.now));
             if (!sc.isRecord(k)) {
                 fail(5, lexer.spot);
                 return;
@@ -2845,7 +2911,8 @@ public final class WireHouse {
         }
 
         private void constant(int into, int enumType) {
-            int c = sc.fieldNamed(enumType, lexer, lexer.now);
+            int at = lexer.startOf(lexer.now);
+            int c = sc.fieldNamed(enumType, lexer.canon, at, lexer.lengthOf(lexer.now));
             if (c < 0) {
                 fail(5, lexer.spot);
                 return;
@@ -2869,7 +2936,11 @@ public final class WireHouse {
                 lexer.step();
             }
             long v = lexer.valueOf(lexer.now);
-            expect(T_NUMBER);
+            if (lexer.kind == T_NUMBER) {
+                lexer.step();
+            } else {
+                refuse();
+            }
             return below ? -v : v;
         }
 
@@ -2909,7 +2980,8 @@ public final class WireHouse {
                 refuse();
                 return 0;
             }
-            int j = sc.fieldNamed(k, lexer, lexer.now);
+            int at = lexer.startOf(lexer.now);
+            int j = sc.fieldNamed(k, lexer.canon, at, lexer.lengthOf(lexer.now));
             int one = sc.fields.at(k, j, F_ONE);
             if (j < 0) {
                 fail(5, lexer.spot);
@@ -3008,7 +3080,8 @@ public final class WireHouse {
                 refuse();
                 return;
             }
-            int j = sc.fieldNamed(type, lexer, lexer.now);
+            int at = lexer.startOf(lexer.now);
+            int j = sc.fieldNamed(type, lexer.canon, at, lexer.lengthOf(lexer.now));
             if (j < 0) {
                 fail(5, lexer.spot);
                 return;
@@ -3119,7 +3192,7 @@ public final class WireHouse {
         void takeAway() {
             int holder = tree.fieldNode(sc, type, field, record);
             if (part == 0) {
-                tree.unlink(record, holder);
+                tree.leave(record, sc.fields.at(type, field, F_RANK));
             } else {
                 tree.unlink(holder, node);
                 tree.settle(sc, type, field, record);
@@ -3308,10 +3381,11 @@ public final class WireHouse {
             }
         }
 
-        /** READS a STREAM on into the record at the root of a tree. */
-        void takeStream(Schema schemaHere, Tree into, Bytes from) {
+        /** READS a STREAM on into the record at the root of a tree: the fault. */
+        int takeStream(Schema schemaHere, Tree into, Bytes from) {
             begin(schemaHere, into, from);
             streamRecord(ROOT, into.type, row.n, 1);
+            return fault;
         }
 
         private void streamRecord(int rec, int k, int end, int depth) {
@@ -3324,7 +3398,11 @@ public final class WireHouse {
                     return;
                 }
                 if (j < 0 || !isWireOf(k, j, wire)) {
-                    stranger(rec, key, end);
+                    int from = at;
+                    skipValue(wire, end);
+                    if (fault == 0) {
+                        tree.addStranger(rec, key, row, from, at - from);
+                    }
                 } else if (sc.fields.at(k, j, F_MODE) == MAP) {
                     streamEntry(tree.come(sc, k, j, rec), k, j, end, depth, keyAt);
                 } else if (sc.fields.at(k, j, F_MODE) == MANY) {
@@ -3363,17 +3441,15 @@ public final class WireHouse {
         private long varint(int end) {
             int start = at;
             long v = 0;
-            for (int i = 0; i < 10; i++) {
-                if (at >= end) {
-                    fail(1, end);
+            for (int i = 0; i < 10 && fault == 0; i++) {
+                boolean ends = at < 0 || at >= end || at >= row.data.length;
+                int b = ends ? 0 : row.data[at] & 255;
+                if (ends || i == 9 && b > 1) {
+                    fault = ends ? 1 : 2;
+                    place = ends ? end : start;
                     return 0;
                 }
-                int b = row.at(at);
                 at++;
-                if (i == 9 && b > 1) {
-                    fail(2, start);
-                    return 0;
-                }
                 v |= (long) (b & 127) << 7 * i;
                 if (b < 128) {
                     return v;
@@ -3408,18 +3484,6 @@ public final class WireHouse {
                 at += len;
             } else {
                 fewBytes(wire == 1 ? 8 : 4, end);
-            }
-        }
-
-        private void stranger(int rec, long key, int end) {
-            int from = at;
-            skipValue((int) (key & 7), end);
-            if (fault == 0) {
-                int n = tree.append(rec);
-                tree.nodes.set(n, TAG, STRANGER);
-                tree.nodes.set(n, SHAPE, A_STRANGER);
-                tree.nodes.set(n, NUM, key);
-                tree.setString(n, row, from, at - from);
             }
         }
 
@@ -3595,13 +3659,14 @@ public final class WireHouse {
             }
         }
 
-        /** READS a LINEAR row into a tree that has only its root. */
-        void takeLinear(Schema schemaHere, Tree into, Bytes from) {
+        /** READS a LINEAR row into a tree that has only its root: the fault. */
+        int takeLinear(Schema schemaHere, Tree into, Bytes from) {
             begin(schemaHere, into, from);
             linearRecord(ROOT, into.type, 1);
             if (fault == 0 && at < row.n) {
                 fail(10, at);
             }
+            return fault;
         }
 
         private void linearRecord(int rec, int k, int depth) {
@@ -3812,9 +3877,11 @@ public final class WireHouse {
         }
 
         private void linearNumberOut(long v, int kind, int type) {
-            if (kind == ENUM && sc.numbered(type, v) < 0) {
-                strange = true;
+            boolean known = kind != ENUM;
+            for (int c = 0; !known && c < sc.types.at(type, TY_COUNT); c++) {
+                known = sc.fields.num(type, c, F_NUMBER) == v;
             }
+            strange = strange || !known;
             row.addBig(v, bitsOf(kind) == 64 ? 8 : 4);
         }
 
@@ -3849,8 +3916,9 @@ public final class WireHouse {
         private Schema sc;
         private Tree tree;
         private Bytes row;
-        /** Words that the row has, or those that are written so far. */
+        /** How many words the row has, or those that are written so far; and those read. */
         private long words;
+        private final long[] wordsRead = new long[ROOM / 8];
         private int walked, items;
         int fault, place;
         /** What the latest pointer leads to: where, how many data words, pointers, items. */
@@ -3948,7 +4016,7 @@ public final class WireHouse {
             long mask = size >= 64 ? -1L : (1L << size) - 1;
             long bits = row.littleAt(from, 8) | (v & mask) << (bit & 63);
             for (int i = 0; i < 8; i++) {
-                row.put(from + i, (int) (bits >>> 8 * i));
+                row.change(from + i, (int) (bits >>> 8 * i));
             }
         }
 
@@ -3972,24 +4040,22 @@ public final class WireHouse {
 
         private void dataOut(int to, int node, int k) {
             for (int n = tree.first(node); n != 0; n = tree.next(n)) {
-                if (tree.shape(n) != A_STRANGER) {
-                    int j = sc.fields.at(k, tree.nodes.at(n, TAG), F_ORDER);
-                    fieldOut(to, n, k, j);
+                if (tree.shape(n) == A_STRANGER) {
+                    return;
                 }
-            }
-        }
-
-        private void fieldOut(int to, int node, int k, int j) {
-            int at = sc.fields.at(k, j, F_PLACE);
-            int flag = sc.fields.at(k, j, F_FLAG);
-            boolean inOne = sc.fields.at(k, j, F_ONE) >= 0;
-            long v = tree.nodes.num(node, NUM);
-            if (flag >= 0) {
-                putBits(to, flag, inOne ? 16 : 1, inOne ? sc.tagOf(k, j) : 1);
-            }
-            if (at >= 0) {
-                long before = sc.isPlain(k, j) ? sc.fields.num(k, j, F_DEFAULT) : 0;
-                putBits(to, at, inOne ? 64 : bitsOf(sc.fields.at(k, j, F_KIND)), v ^ before);
+                int j = sc.fields.at(k, tree.nodes.at(n, TAG), F_ORDER);
+                int at = sc.fields.at(k, j, F_PLACE);
+                int flag = sc.fields.at(k, j, F_FLAG);
+                boolean inOne = sc.fields.at(k, j, F_ONE) >= 0;
+                long v = tree.nodes.num(n, NUM);
+                if (flag >= 0) {
+                    putBits(to, flag, inOne ? 16 : 1, inOne ? sc.fields.at(k, j, F_TAG) : 1);
+                }
+                if (at >= 0) {
+                    long before = sc.isPlain(k, j) ? sc.fields.num(k, j, F_DEFAULT) : 0;
+                    int bits = inOne ? 64 : bitsOf(sc.fields.at(k, j, F_KIND));
+                    putBits(to, at, bits, v ^ before);
+                }
             }
         }
 
@@ -4034,7 +4100,7 @@ public final class WireHouse {
             int to = claim(wordsOf(TO_BYTES, size));
             putBits(at, 0, 64, pointerWord(1, at, to, TO_BYTES | size << 3));
             for (int i = 0; i < len; i++) {
-                row.put(to * 8 + i, tree.pool.at(off + i));
+                row.change(to * 8 + i, tree.pool.at(off + i));
             }
         }
 
@@ -4114,25 +4180,30 @@ public final class WireHouse {
 
         // ---- read
 
-        /** READS a SLOTTED row into a tree that has only its root. */
-        void takeSlotted(Schema schemaHere, Tree into, Bytes from) {
+        /** READS a SLOTTED row into a tree that has only its root: the fault. */
+        int takeSlotted(Schema schemaHere, Tree into, Bytes from) {
             begin(schemaHere, into, from);
             words = row.n / 8;
+            for (int i = 0; i < words && i < wordsRead.length; i++) {
+                wordsRead[i] = row.littleAt(8 * i, 8);
+            }
             keyNodes = tree.fresh();
             for (int i = 1; i < 2 * MOST_DEEP + 2; i++) {
                 tree.fresh();
             }
             if (row.n == 0 || row.n % 8 != 0) {
                 fail(1, row.n);
-            } else if (row.littleAt(0, 8) == 0) {
+            } else if (wordAt(0) == 0) {
                 recordIn(0, 0, 0, ROOT, into.type, 1);
             } else if (leads(0, TO_RECORD)) {
                 recordIn(target, data, pointers, ROOT, into.type, 1);
             }
+            return fault;
         }
 
         private long wordAt(long word) {
-            return word >= 0 && word < words ? row.littleAt((int) word * 8, 8) : 0;
+            boolean inside = word >= 0 && word < words && word < wordsRead.length;
+            return inside ? wordsRead[(int) word] : 0;
         }
 
         /** Follows a pointer that is not 0 to a record or a list of a SORT. */
@@ -4190,8 +4261,10 @@ public final class WireHouse {
             if (bit < 0 || bit >> 6 >= dataWords) {
                 return 0;
             }
+            int word = from + (bit >> 6);
+            boolean inside = word >= 0 && word < words && word < wordsRead.length;
             long mask = size >= 64 ? -1L : (1L << size) - 1;
-            return wordAt((long) from + (bit >> 6)) >>> (bit & 63) & mask;
+            return inside ? wordsRead[word] >>> (bit & 63) & mask : 0;
         }
 
         private void recordIn(int from, int dataWords, int pointerWords, int rec, int k, int depth) {
@@ -4203,7 +4276,9 @@ public final class WireHouse {
             }
             for (int j = 0; j < sc.fieldCount(k) && fault == 0; j++) {
                 if (sc.fields.at(k, j, F_PLACE) >= 0 && isFlagged(from, dataWords, k, j)) {
-                    numberIn(from, dataWords, rec, k, j);
+                    int n = tree.come(sc, k, j, rec);
+                    tree.nodes.set(n, NUM, numberAt(from, dataWords, k, j));
+                    tree.settle(sc, k, j, rec);
                 }
             }
             for (int p = 0; p < sc.types.at(k, TY_POINTERS) && fault == 0; p++) {
@@ -4222,12 +4297,12 @@ public final class WireHouse {
                 return true;
             }
             if (sc.fields.at(k, j, F_ONE) >= 0) {
-                return bitsAt(from, dataWords, flag, 16) == sc.tagOf(k, j);
+                return bitsAt(from, dataWords, flag, 16) == sc.fields.at(k, j, F_TAG);
             }
             return bitsAt(from, dataWords, flag, 1) == 1;
         }
 
-        private void numberIn(int from, int dataWords, int rec, int k, int j) {
+        private long numberAt(int from, int dataWords, int k, int j) {
             int kind = sc.fields.at(k, j, F_KIND);
             boolean inOne = sc.fields.at(k, j, F_ONE) >= 0;
             int at = sc.fields.at(k, j, F_PLACE);
@@ -4235,7 +4310,7 @@ public final class WireHouse {
             if (sc.isPlain(k, j)) {
                 v ^= sc.fields.num(k, j, F_DEFAULT);
             }
-            tree.setNumber(sc, k, j, rec, narrow(kind, v));
+            return narrow(kind, v);
         }
 
         private int fieldOfPointer(int from, int dataWords, int k, int pointer) {
@@ -4426,22 +4501,25 @@ public final class WireHouse {
                 known[i] = -1;
             }
             records(a, b);
+            int level = ALIKE;
             boolean changed = true;
-            // each round that changes anything raises a pair, and each pair rises three times
-            for (int turn = 0; turn < 4 * PAIRS && changed; turn++) {
+            // each round that changes anything adds or raises a pair; a, b is the last of each
+            for (int turn = 0; turn < 5 * PAIRS && changed; turn++) {
+                int before = waiting;
                 changed = false;
-                for (int i = 0; i < waiting && i < PAIRS; i++) {
+                for (int i = Math.min(waiting, PAIRS) - 1; i >= 0; i--) {
                     int pair = waits[i];
-                    int before = waiting;
-                    int level = judgePair(pair / Schema.TYPES, pair % Schema.TYPES);
+                    int a2 = pair / Schema.TYPES;
+                    int b2 = pair % Schema.TYPES;
+                    level = format == LINEAR ? linearPair(a2, b2) : numberedPair(a2, b2);
                     if (pair >= 0 && pair < PAIRS && level > known[pair]) {
                         known[pair] = level;
                         changed = true;
                     }
-                    changed = changed || waiting > before;
                 }
+                changed = changed || waiting > before;
             }
-            return judgePair(a, b);
+            return level;
         }
 
         /** What is known of two records, which are judged from now on. */
@@ -4458,11 +4536,8 @@ public final class WireHouse {
             return Math.max(ALIKE, known[pair]);
         }
 
-        private int judgePair(int a, int b) {
+        private int numberedPair(int a, int b) {
             number = 0;
-            if (format == LINEAR) {
-                return linearPair(a, b);
-            }
             int worst = ALIKE;
             for (int rank = 0; rank < old.fieldCount(a); rank++) {
                 int f = old.fields.at(a, rank, F_ORDER);
@@ -4487,9 +4562,9 @@ public final class WireHouse {
             int kind = old.fields.at(a, f, F_KIND);
             int newKind = fresh.fields.at(b, g, F_KIND);
             if (mode == MAP || newMode == MAP) {
-                return mode == newMode ? mapKinds(a, f, b, g) : BREAKS;
+                return mode == newMode ? fieldKinds(a, f, b, g) : BREAKS;
             }
-            int kinds = itemKinds(a, f, b, g);
+            int kinds = fieldKinds(a, f, b, g);
             if (mode == MANY && newMode == MANY) {
                 boolean unlike = isNumber(kind) != isNumber(newKind);
                 return unlike || wireOf(kind) != wireOf(newKind) ? BREAKS : kinds;
@@ -4529,14 +4604,15 @@ public final class WireHouse {
                     newFrom, fresh.fields.at(b, g, F_DEFAULT_LEN));
         }
 
-        private int mapKinds(int a, int f, int b, int g) {
-            int keys = kinds(old.fields.at(a, f, F_KEY), NO, fresh.fields.at(b, g, F_KEY), NO);
-            return Math.max(keys, itemKinds(a, f, b, g));
-        }
-
-        private int itemKinds(int a, int f, int b, int g) {
-            return kinds(old.fields.at(a, f, F_KIND), old.fields.at(a, f, F_TYPE),
+        /** What KINDS say of two fields; of two MAPS of keys and items. */
+        private int fieldKinds(int a, int f, int b, int g) {
+            int keys = ALIKE;
+            if (old.fields.at(a, f, F_MODE) == MAP && fresh.fields.at(b, g, F_MODE) == MAP) {
+                keys = kinds(old.fields.at(a, f, F_KEY), NO, fresh.fields.at(b, g, F_KEY), NO);
+            }
+            int items = kinds(old.fields.at(a, f, F_KIND), old.fields.at(a, f, F_TYPE),
                 fresh.fields.at(b, g, F_KIND), fresh.fields.at(b, g, F_TYPE));
+            return Math.max(keys, items);
         }
 
         private int kinds(int kind, int type, int newKind, int newType) {
@@ -4573,12 +4649,16 @@ public final class WireHouse {
         }
 
         private boolean lacksConstant(int type, int newType) {
-            for (int c = 0; c < old.fieldCount(type); c++) {
-                if (fresh.numbered(newType, old.fields.num(type, c, F_NUMBER)) < 0) {
-                    return true;
+            boolean lacks = false;
+            for (int c = 0; c < old.types.at(type, TY_COUNT) && !lacks; c++) {
+                lacks = true;
+                for (int d = 0; d < fresh.types.at(newType, TY_COUNT); d++) {
+                    boolean same = old.fields.num(type, c, F_NUMBER)
+                        == fresh.fields.num(newType, d, F_NUMBER);
+                    lacks = lacks && !same;
                 }
             }
-            return false;
+            return lacks;
         }
 
         // ---- LINEAR
@@ -4598,6 +4678,7 @@ public final class WireHouse {
         }
 
         private int linearPair(int a, int b) {
+            number = 0;
             if (partCount(old, a) != partCount(fresh, b)) {
                 return BREAKS;
             }
@@ -4621,15 +4702,14 @@ public final class WireHouse {
             int newOne = fresh.fields.at(b, g, F_ONE);
             if (one < 0 || newOne < 0) {
                 boolean alike = one < 0 && newOne < 0 && linearMode(old, a, f) == linearMode(fresh, b, g);
-                boolean map = old.fields.at(a, f, F_MODE) == MAP;
-                return !alike ? BREAKS : map ? mapKinds(a, f, b, g) : itemKinds(a, f, b, g);
+                return alike ? fieldKinds(a, f, b, g) : BREAKS;
             }
             int worst = ALIKE;
             for (int i = 0; i < old.ones.at(a, one, O_COUNT); i++) {
                 int e = f + i;
                 int h = fresh.numbered(b, old.fields.num(a, e, F_NUMBER));
                 boolean has = h >= 0 && fresh.fields.at(b, h, F_ONE) == newOne;
-                worst = Math.max(worst, has ? itemKinds(a, e, b, h) : BREAKS);
+                worst = Math.max(worst, has ? fieldKinds(a, e, b, h) : BREAKS);
             }
             return worst;
         }
@@ -4653,7 +4733,7 @@ public final class WireHouse {
             if (plain && !isSameDefault(a, f, b, g)) {
                 return BREAKS;
             }
-            return mode == MAP ? mapKinds(a, f, b, g) : itemKinds(a, f, b, g);
+            return fieldKinds(a, f, b, g);
         }
 
         private boolean isSamePlace(int a, int f, int b, int g) {
@@ -4662,7 +4742,7 @@ public final class WireHouse {
             if (one >= 0 != newOne >= 0) {
                 return false;
             }
-            if (one >= 0 && (old.tagOf(a, f) != fresh.tagOf(b, g)
+            if (one >= 0 && (old.fields.at(a, f, F_TAG) != fresh.fields.at(b, g, F_TAG)
                     || fresh.ones.at(b, newOne, O_COUNT) < old.ones.at(a, one, O_COUNT))) {
                 return false;
             }
@@ -4730,15 +4810,15 @@ public final class WireHouse {
     /** THE NET with its LETTERS, the server with its CELLS and answers, clients with their calls. */
     private static final class Net {
         private static final int KEPT = CLIENTS * CALLS, WAITING = 4, REMEMBERED = 6,
-            BODY = 84 * PART, CELLS_ROW = 0, BEFORE_ROW = 1, RAN_ROW = 2;
+            BODY = 84 * PART, CELLS_ROW = 0, BEFORE_ROW = 1, RAN_ROW = 2, STACK_ROW = 3;
         /** LETTERS, and behind them the one that is DELIVERED. */
         final Table letters = new Table(1, LETTERS + 1, 6);
         private final Bytes letterText = new Bytes((LETTERS + 1) * PART);
         int letterCount, lost, time, answerCount;
         /** What the server goes by; schema is NO when there is no server. */
         int schema = NO, service, format;
-        /** Cells, cells before the call, and how often calls were DONE. */
-        private final Table state = new Table(1, 3, Schema.CALLS_EACH);
+        /** Cells, cells before the call, how often calls were DONE, and what exps come to. */
+        private final Table state = new Table(1, 4, Schema.NODES_EACH + 2);
         final Table clients = new Table(1, CLIENTS, 6);
         final Table calls = new Table(1, KEPT, 5);
         private final Bytes[] bodies = new Bytes[KEPT];
@@ -4749,7 +4829,6 @@ public final class WireHouse {
         private final Table answers = new Table(1, REMEMBERED, 2);
         private final Bytes[] answerTexts = new Bytes[REMEMBERED];
         private int touches;
-        private final long[] stack = new long[Schema.NODES_EACH + 2];
         private boolean dividedByNone;
 
         Net() {
@@ -5016,21 +5095,18 @@ public final class WireHouse {
                 if (op <= OP_IN) {
                     long v = op == OP_NUMBER ? arg : op == OP_CELL ? cellAt((int) arg)
                         : fieldValue(sc, (int) arg, in);
-                    if (top >= 0 && top < stack.length) {
-                        stack[top] = v;
-                    }
+                    state.set(STACK_ROW, top, v);
                     top++;
                 } else {
                     top = op <= OP_NOT ? top : top - 1;
-                    if (top > 0 && top < stack.length) {
-                        stack[top - 1] = workOut(op, stack[top - 1], stack[top]);
-                    }
+                    long a = state.num(STACK_ROW, top - 1);
+                    state.set(STACK_ROW, top - 1, workOut(op, a, state.num(STACK_ROW, top)));
                 }
                 if (dividedByNone) {
                     return 0;
                 }
             }
-            return stack[0];
+            return state.num(STACK_ROW, 0);
         }
 
         private long workOut(int op, long a, long b) {
