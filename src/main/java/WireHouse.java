@@ -130,8 +130,8 @@ public final class WireHouse {
     private final Texts texts;
     private final Serial serial;
     private final Slotted slotted;
-    private final Judge judge;
-    private final Net net;
+    private final Judge judging;
+    private final Net post;
     /** Messages that are worked on, and rows that are written, ahead of what they become. */
     private final Tree work = new Tree(6000, 3 * ROOM), made = new Tree(MOST_VALUES + 2, ROOM);
     private final Bytes wire = new Bytes(4 * ROOM), body = new Bytes(4 * ROOM);
@@ -155,8 +155,8 @@ public final class WireHouse {
         texts = new Texts(lexer, spare, work, wire);
         serial = new Serial(spare, work, wire);
         slotted = new Slotted(spare, work, wire);
-        judge = new Judge(spare, work);
-        net = new Net();
+        judging = new Judge(spare, work);
+        post = new Net();
     }
 
     private static boolean isRow(int row) {
@@ -265,7 +265,7 @@ public final class WireHouse {
                 messages[m].there = false;
             }
         }
-        net.letGo(s);
+        post.letGo(s);
         return schemas[s].typeCount;
     }
 
@@ -623,14 +623,14 @@ public final class WireHouse {
         if (!messages[m].there || !messages[n].there || !isOneRecord(m, n)) {
             return NO;
         }
-        return judge.differences(schemaOf(m), messages[m], messages[n]);
+        return judging.differences(schemaOf(m), messages[m], messages[n]);
     }
 
     public int path(int k, int row) {
-        if (!isRow(row) || !judge.hasPath(k)) {
+        if (!isRow(row) || !judging.hasPath(k)) {
             return BAD;
         }
-        judge.pathInto(k, rows[row]);
+        judging.pathInto(k, rows[row]);
         return rows[row].n;
     }
 
@@ -647,11 +647,11 @@ public final class WireHouse {
         if (!schemas[s].there || !schemas[t].there) {
             return NO;
         }
-        return judge.judgeRecords(schemas[s], a, schemas[t], b, format);
+        return judging.judgeRecords(schemas[s], a, schemas[t], b, format);
     }
 
     public int where() {
-        return judge.judgedBy();
+        return judging.judgedBy();
     }
 
     // ---- calls
@@ -666,7 +666,7 @@ public final class WireHouse {
         if (v >= schemas[s].serviceCount) {
             return BAD;
         }
-        net.open(s, v, format);
+        post.open(s, v, format);
         return 1;
     }
 
@@ -677,16 +677,16 @@ public final class WireHouse {
         if (schemas[s].there && v >= schemas[s].serviceCount) {
             return BAD;
         }
-        if (!schemas[s].there || !net.hasServer()) {
+        if (!schemas[s].there || !post.hasServer()) {
             return NO;
         }
-        net.join(c, s, v);
+        post.join(c, s, v);
         return 1;
     }
 
     /** The schema that a client goes by. */
     private int clientSchema(int c) {
-        int s = net.clients.at(c, CL_SCHEMA);
+        int s = post.clients.at(c, CL_SCHEMA);
         return isSchema(s) ? s : 0;
     }
 
@@ -695,77 +695,77 @@ public final class WireHouse {
             return BAD;
         }
         int s = clientSchema(c);
-        int v = net.clients.at(c, CL_SERVICE);
+        int v = post.clients.at(c, CL_SERVICE);
         Schema sc = schemas[s];
-        if (net.hasClient(c) && j >= sc.callCount(v)) {
+        if (post.hasClient(c) && j >= sc.callCount(v)) {
             return BAD;
         }
-        if (!net.hasClient(c) || !messages[m].there || messages[m].schema != s
+        if (!post.hasClient(c) || !messages[m].there || messages[m].schema != s
                 || messages[m].type != sc.calls.at(v, j, C_IN)
-                || !giveWire(sc, messages[m], net.format)) {
+                || !giveWire(sc, messages[m], post.format)) {
             return NO;
         }
-        if (net.isTired(c) || wire.isOver(ROOM - 16)) {
+        if (post.isTired(c) || wire.isOver(ROOM - 16)) {
             return FULL;
         }
         body.empty();
         body.addBig(sc.nameMark(v), 8);
-        body.addBig(net.nextXid(c), 4);
+        body.addBig(post.nextXid(c), 4);
         body.addBig(sc.calls.at(v, j, C_NUMBER), 4);
         body.addAll(wire, 0, wire.n);
-        return net.makeCall(c, j, body);
+        return post.makeCall(c, j, body);
     }
 
     public int letter(int i, int what) {
-        if (!net.hasLetter(i) || what < 0) {
+        if (!post.hasLetter(i) || what < 0) {
             return BAD;
         }
-        return what <= L_LEN ? net.letters.at(i, what) : net.letterByte(i, what - 6);
+        return what <= L_LEN ? post.letters.at(i, what) : post.letterByte(i, what - 6);
     }
 
     public int deliver(int i) {
-        if (!net.hasLetter(i)) {
+        if (!post.hasLetter(i)) {
             return BAD;
         }
-        net.pull(i);
-        if (net.letters.at(LETTERS, L_TO) == SERVER) {
-            int slot = net.arriveAtServer();
+        post.pull(i);
+        if (post.letters.at(LETTERS, L_TO) == SERVER) {
+            int slot = post.arriveAtServer();
             if (slot >= 0) {
-                serve(net.callBody(slot));
+                serve(post.callBody(slot));
             }
         } else {
-            int r = net.arriveAtClient();
-            int code = r < 0 ? 0 : (int) net.bodyAt(r).bigAt(4, 4);
-            if (r >= 0 && code == 0 && !takeAnswer(r, net.letters.at(LETTERS, L_TO))) {
+            int r = post.arriveAtClient();
+            int code = r < 0 ? 0 : (int) post.bodyAt(r).bigAt(4, 4);
+            if (r >= 0 && code == 0 && !takeAnswer(r, post.letters.at(LETTERS, L_TO))) {
                 code = 7;
             }
-            net.end(r, code == 0 ? ANSWERED : FAILED, code);
+            post.end(r, code == 0 ? ANSWERED : FAILED, code);
         }
-        return net.letterCount;
+        return post.letterCount;
     }
 
     /** The server answers a call whose BODY is all there. */
     private void serve(Bytes call) {
-        int s = isSchema(net.schema) ? net.schema : 0;
+        int s = isSchema(post.schema) ? post.schema : 0;
         Schema sc = schemas[s];
         int xid = (int) call.bigAt(8, 4);
-        int j = sc.callNumbered(net.service, (int) call.bigAt(12, 4));
+        int j = sc.callNumbered(post.service, (int) call.bigAt(12, 4));
         int code = 0;
-        if (call.bigAt(0, 8) != sc.nameMark(net.service)) {
+        if (call.bigAt(0, 8) != sc.nameMark(post.service)) {
             code = 1;
         } else if (j < 0) {
             code = 2;
         }
         wire.empty();
         wire.addAll(call, 16, call.n - 16);
-        if (code == 0 && takeWire(s, sc.calls.at(net.service, j, C_IN), net.format, wire) != 0) {
+        if (code == 0 && takeWire(s, sc.calls.at(post.service, j, C_IN), post.format, wire) != 0) {
             code = 3;
         }
         if (code == 0) {
-            made.begin(s, sc.calls.at(net.service, j, C_OUT));
-            code = net.run(sc, j, work, made);
-            if (code == 0 && (!giveWire(sc, made, net.format) || wire.isOver(ROOM - 8))) {
-                net.restoreCells();
+            made.begin(s, sc.calls.at(post.service, j, C_OUT));
+            code = post.run(sc, j, work, made);
+            if (code == 0 && (!giveWire(sc, made, post.format) || wire.isOver(ROOM - 8))) {
+                post.restoreCells();
                 code = 6;
             }
         }
@@ -773,65 +773,65 @@ public final class WireHouse {
         body.addBig(xid, 4);
         body.addBig(code, 4);
         body.addAll(wire, 0, code == 0 ? wire.n : 0);
-        net.reply(body);
+        post.reply(body);
     }
 
     /** READS an answer to a client's call into the work tree: whether it can be. */
     private boolean takeAnswer(int r, int c) {
         int s = clientSchema(c);
-        int j = net.calls.at(r, K_PLACE);
-        Bytes answer = net.bodyAt(r);
+        int j = post.calls.at(r, K_PLACE);
+        Bytes answer = post.bodyAt(r);
         wire.empty();
         wire.addAll(answer, 8, answer.n - 8);
-        int k = schemas[s].calls.at(net.clients.at(c, CL_SERVICE), j, C_OUT);
-        return takeWire(s, k, net.format, wire) == 0;
+        int k = schemas[s].calls.at(post.clients.at(c, CL_SERVICE), j, C_OUT);
+        return takeWire(s, k, post.format, wire) == 0;
     }
 
     public int lose(int i) {
-        if (!net.hasLetter(i)) {
+        if (!post.hasLetter(i)) {
             return BAD;
         }
-        net.pull(i);
-        return net.letterCount;
+        post.pull(i);
+        return post.letterCount;
     }
 
     public int twice(int i) {
-        if (!net.hasLetter(i)) {
+        if (!post.hasLetter(i)) {
             return BAD;
         }
-        if (net.letterCount >= LETTERS) {
+        if (post.letterCount >= LETTERS) {
             return FULL;
         }
-        net.again(i);
-        return net.letterCount;
+        post.again(i);
+        return post.letterCount;
     }
 
     public int tick(int n) {
         if (n < 1 || n > 100) {
             return BAD;
         }
-        if (!net.hasServer()) {
+        if (!post.hasServer()) {
             return NO;
         }
         for (int i = 0; i < n; i++) {
-            net.oneTick();
+            post.oneTick();
         }
-        return net.time;
+        return post.time;
     }
 
     public int outcome(int c, int x, int what) {
-        if (!isClient(c) || what < 0 || what > K_PLACE || net.callRow(c, x) < 0) {
+        if (!isClient(c) || what < 0 || what > K_PLACE || post.callRow(c, x) < 0) {
             return BAD;
         }
-        return net.calls.at(net.callRow(c, x), what);
+        return post.calls.at(post.callRow(c, x), what);
     }
 
     public int take(int c, int x, int m) {
-        if (!isClient(c) || !isMessage(m) || net.callRow(c, x) < 0) {
+        if (!isClient(c) || !isMessage(m) || post.callRow(c, x) < 0) {
             return BAD;
         }
-        int r = net.callRow(c, x);
-        if (net.calls.at(r, K_STATE) != ANSWERED || !takeAnswer(r, c)) {
+        int r = post.callRow(c, x);
+        if (post.calls.at(r, K_STATE) != ANSWERED || !takeAnswer(r, c)) {
             return NO;
         }
         messages[m].become(work);
@@ -839,33 +839,33 @@ public final class WireHouse {
     }
 
     public long cell(int k) {
-        boolean has = net.hasServer() && isSchema(net.schema) && k >= 0
-            && k < schemas[net.schema].cellCount(net.service);
-        return has ? net.cellAt(k) : 0;
+        boolean has = post.hasServer() && isSchema(post.schema) && k >= 0
+            && k < schemas[post.schema].cellCount(post.service);
+        return has ? post.cellAt(k) : 0;
     }
 
     public int ran(int j) {
         if (j < 0) {
             return BAD;
         }
-        if (!net.hasServer() || !isSchema(net.schema)) {
+        if (!post.hasServer() || !isSchema(post.schema)) {
             return NO;
         }
-        return j < schemas[net.schema].callCount(net.service) ? net.ranAt(j) : BAD;
+        return j < schemas[post.schema].callCount(post.service) ? post.ranAt(j) : BAD;
     }
 
     public int crash() {
-        return net.hasServer() ? net.forget() : NO;
+        return post.hasServer() ? post.forget() : NO;
     }
 
     public int net(int what) {
         switch (what) {
-            case 0: return net.letterCount;
-            case 1: return net.time;
-            case 2: return net.answerCount;
-            case 3: return net.pendingCount();
+            case 0: return post.letterCount;
+            case 1: return post.time;
+            case 2: return post.answerCount;
+            case 3: return post.pendingCount();
             case 4: return tape.n;
-            case 5: return net.lost;
+            case 5: return post.lost;
             default: return BAD;
         }
     }
@@ -3229,10 +3229,10 @@ public final class WireHouse {
             out = into;
             out.empty();
             out.addAll(sc.text, sc.types.at(of.type, TY_NAME), sc.types.at(of.type, TY_NAME_LEN));
-            printRecord(ROOT, of.type);
+            printRecord(ROOT, of.type, 1);
         }
 
-        private void printRecord(int rec, int k) {
+        private void printRecord(int rec, int k, int depth) {
             char before = '{';
             for (int n = tree.first(rec); n != 0; n = tree.next(n)) {
                 if (tree.shape(n) != A_STRANGER) {
@@ -3240,7 +3240,7 @@ public final class WireHouse {
                     out.add(before);
                     out.addAll(sc.text, sc.fields.at(k, j, F_NAME), sc.fields.at(k, j, F_NAME_LEN));
                     out.add(':');
-                    printField(n, k, j);
+                    printField(n, k, j, depth);
                     before = ',';
                 }
             }
@@ -3250,12 +3250,12 @@ public final class WireHouse {
             out.add('}');
         }
 
-        private void printField(int node, int k, int j) {
+        private void printField(int node, int k, int j, int depth) {
             int mode = sc.fields.at(k, j, F_MODE);
             int kind = sc.fields.at(k, j, F_KIND);
             int type = sc.fields.at(k, j, F_TYPE);
             if (mode <= MAYBE) {
-                printValue(node, kind, type);
+                printValue(node, kind, type, depth);
                 return;
             }
             char before = mode == MANY ? '[' : '<';
@@ -3264,7 +3264,7 @@ public final class WireHouse {
                 if (mode == MAP) {
                     printKey(n, sc.fields.at(k, j, F_KEY));
                 }
-                printValue(n, kind, type);
+                printValue(n, kind, type, depth);
                 before = ',';
             }
             out.add(mode == MANY ? ']' : '>');
@@ -3279,9 +3279,9 @@ public final class WireHouse {
             out.add(':');
         }
 
-        private void printValue(int node, int kind, int type) {
-            if (kind == RECORD) {
-                printRecord(node, type);
+        private void printValue(int node, int kind, int type, int depth) {
+            if (kind == RECORD && depth < MOST_DEEP) {
+                printRecord(node, type, depth + 1);
             } else if (kind == TEXT || kind == BYTES) {
                 printString(tree.nodes.at(node, OFF), tree.nodes.at(node, LEN));
             } else if (kind == BOOL) {
@@ -3579,10 +3579,10 @@ public final class WireHouse {
         void giveStream(Schema schemaHere, Tree of, Bytes into) {
             begin(schemaHere, of, into);
             into.empty();
-            streamOut(ROOT, of.type);
+            streamOut(ROOT, of.type, 1);
         }
 
-        private void streamOut(int rec, int k) {
+        private void streamOut(int rec, int k, int depth) {
             for (int n = tree.first(rec); n != 0; n = tree.next(n)) {
                 int j = sc.fields.at(k, tree.nodes.at(n, TAG), F_ORDER);
                 int mode = sc.fields.at(k, j, F_MODE);
@@ -3590,23 +3590,23 @@ public final class WireHouse {
                     row.addVarint(tree.nodes.num(n, NUM));
                     row.addAll(tree.pool, tree.nodes.at(n, OFF), tree.nodes.at(n, LEN));
                 } else if (mode == MAP) {
-                    entriesOut(n, k, j);
+                    entriesOut(n, k, j, depth);
                 } else if (mode == MANY) {
-                    itemsOut(n, k, j);
+                    itemsOut(n, k, j, depth);
                 } else {
-                    keyedOut(n, sc.fields.num(k, j, F_NUMBER), k, j);
+                    keyedOut(n, sc.fields.num(k, j, F_NUMBER), k, j, depth);
                 }
             }
         }
 
-        private void keyedOut(int node, long number, int k, int j) {
+        private void keyedOut(int node, long number, int k, int j, int depth) {
             int kind = sc.fields.at(k, j, F_KIND);
             row.addVarint(number << 3 | wireOf(kind));
             if (isNumber(kind)) {
                 numberOut(tree.nodes.num(node, NUM), kind);
-            } else if (kind == RECORD) {
+            } else if (kind == RECORD && depth < MOST_DEEP) {
                 int start = row.n;
-                streamOut(node, sc.fields.at(k, j, F_TYPE));
+                streamOut(node, sc.fields.at(k, j, F_TYPE), depth + 1);
                 row.addLengthAhead(start);
             } else {
                 row.addVarint(tree.nodes.at(node, LEN));
@@ -3625,7 +3625,7 @@ public final class WireHouse {
             }
         }
 
-        private void itemsOut(int list, int k, int j) {
+        private void itemsOut(int list, int k, int j, int depth) {
             int kind = sc.fields.at(k, j, F_KIND);
             long number = sc.fields.num(k, j, F_NUMBER);
             if (isNumber(kind)) {
@@ -3638,11 +3638,11 @@ public final class WireHouse {
                 return;
             }
             for (int n = tree.first(list); n != 0; n = tree.next(n)) {
-                keyedOut(n, number, k, j);
+                keyedOut(n, number, k, j, depth);
             }
         }
 
-        private void entriesOut(int map, int k, int j) {
+        private void entriesOut(int map, int k, int j, int depth) {
             int keyKind = sc.fields.at(k, j, F_KEY);
             for (int n = tree.first(map); n != 0; n = tree.next(n)) {
                 row.addVarint(sc.fields.num(k, j, F_NUMBER) << 3 | 2);
@@ -3654,7 +3654,7 @@ public final class WireHouse {
                 } else {
                     numberOut(tree.nodes.num(n, KEY), keyKind);
                 }
-                keyedOut(n, 2, k, j);
+                keyedOut(n, 2, k, j, depth);
                 row.addLengthAhead(start);
             }
         }
@@ -3815,21 +3815,21 @@ public final class WireHouse {
         boolean giveLinear(Schema schemaHere, Tree of, Bytes into) {
             begin(schemaHere, of, into);
             into.empty();
-            linearOut(ROOT, of.type);
+            linearOut(ROOT, of.type, 1);
             return !strange;
         }
 
-        private void linearOut(int rec, int k) {
+        private void linearOut(int rec, int k, int depth) {
             for (int j = 0; j < sc.fieldCount(k); j++) {
                 int one = sc.fields.at(k, j, F_ONE);
                 int n = tree.fieldNode(sc, k, j, rec);
                 int mode = sc.fields.at(k, j, F_MODE);
                 if (one >= 0) {
                     if (j == sc.ones.at(k, one, O_FIRST)) {
-                        oneOut(rec, k, one);
+                        oneOut(rec, k, one, depth);
                     }
                 } else if (mode >= MANY) {
-                    linearItemsOut(n, k, j);
+                    linearItemsOut(n, k, j, depth);
                 } else if (sc.isPlain(k, j) && n == 0) {
                     defaultOut(k, j);
                 } else {
@@ -3837,19 +3837,19 @@ public final class WireHouse {
                         row.addBig(n != 0 ? 1 : 0, 4);
                     }
                     if (n != 0) {
-                        valueOut(n, sc.fields.at(k, j, F_KIND), sc.fields.at(k, j, F_TYPE));
+                        valueOut(n, sc.fields.at(k, j, F_KIND), sc.fields.at(k, j, F_TYPE), depth);
                     }
                 }
             }
         }
 
-        private void oneOut(int rec, int k, int one) {
+        private void oneOut(int rec, int k, int one, int depth) {
             for (int i = 0; i < sc.ones.at(k, one, O_COUNT); i++) {
                 int j = sc.ones.at(k, one, O_FIRST) + i;
                 int n = tree.fieldNode(sc, k, j, rec);
                 if (n != 0) {
                     row.addBig(sc.fields.num(k, j, F_NUMBER), 4);
-                    valueOut(n, sc.fields.at(k, j, F_KIND), sc.fields.at(k, j, F_TYPE));
+                    valueOut(n, sc.fields.at(k, j, F_KIND), sc.fields.at(k, j, F_TYPE), depth);
                     return;
                 }
             }
@@ -3866,9 +3866,9 @@ public final class WireHouse {
             }
         }
 
-        private void valueOut(int node, int kind, int type) {
-            if (kind == RECORD) {
-                linearOut(node, type);
+        private void valueOut(int node, int kind, int type, int depth) {
+            if (kind == RECORD && depth < MOST_DEEP) {
+                linearOut(node, type, depth + 1);
             } else if (isNumber(kind)) {
                 linearNumberOut(tree.nodes.num(node, NUM), kind, type);
             } else {
@@ -3893,7 +3893,7 @@ public final class WireHouse {
             }
         }
 
-        private void linearItemsOut(int list, int k, int j) {
+        private void linearItemsOut(int list, int k, int j, int depth) {
             int keyKind = sc.fields.at(k, j, F_KEY);
             row.addBig(tree.count(list), 4);
             for (int n = tree.first(list); n != 0; n = tree.next(n)) {
@@ -3904,7 +3904,7 @@ public final class WireHouse {
                         linearNumberOut(tree.nodes.num(n, KEY), keyKind, NO);
                     }
                 }
-                valueOut(n, sc.fields.at(k, j, F_KIND), sc.fields.at(k, j, F_TYPE));
+                valueOut(n, sc.fields.at(k, j, F_KIND), sc.fields.at(k, j, F_TYPE), depth);
             }
         }
     }
@@ -3997,7 +3997,7 @@ public final class WireHouse {
             begin(schemaHere, of, into);
             into.empty();
             claim(1);
-            recordOut(0, ROOT, of.type);
+            recordOut(0, ROOT, of.type, 1);
         }
 
         /** Words behind all others: where they begin. */
@@ -4029,13 +4029,13 @@ public final class WireHouse {
             return data | (long) pointers << 16;
         }
 
-        private void recordOut(int at, int node, int k) {
+        private void recordOut(int at, int node, int k, int depth) {
             int dataWords = sc.types.at(k, TY_DATA);
             int size = dataWords + sc.types.at(k, TY_POINTERS);
             int to = size == 0 ? at : claim(size);
             putBits(at, 0, 64, pointerWord(0, at, to, sizes(dataWords, size - dataWords)));
             dataOut(to, node, k);
-            pointersOut(to, node, k);
+            pointersOut(to, node, k, depth);
         }
 
         private void dataOut(int to, int node, int k) {
@@ -4059,34 +4059,35 @@ public final class WireHouse {
             }
         }
 
-        private void pointersOut(int to, int node, int k) {
+        private void pointersOut(int to, int node, int k, int depth) {
             int from = to + sc.types.at(k, TY_DATA);
             for (int p = 0; p < sc.types.at(k, TY_POINTERS); p++) {
                 for (int n = tree.first(node); n != 0; n = tree.next(n)) {
                     int j = sc.fields.at(k, tree.nodes.at(n, TAG), F_ORDER);
                     if (tree.shape(n) != A_STRANGER && sc.fields.at(k, j, F_POINTER) == p) {
-                        objectOut(from + p, n, k, j);
+                        objectOut(from + p, n, k, j, depth);
                     }
                 }
             }
         }
 
-        private void objectOut(int at, int node, int k, int j) {
+        private void objectOut(int at, int node, int k, int j, int depth) {
             int mode = sc.fields.at(k, j, F_MODE);
             if (mode == MAP) {
-                mapOut(at, node, k, j);
+                mapOut(at, node, k, j, depth);
             } else if (mode == MANY) {
-                listOut(at, node, sc.fields.at(k, j, F_KIND), sc.fields.at(k, j, F_TYPE));
+                listOut(at, node, sc.fields.at(k, j, F_KIND), sc.fields.at(k, j, F_TYPE), depth);
             } else {
-                int type = sc.fields.at(k, j, F_TYPE);
-                valueOut(at, node, sc.fields.at(k, j, F_KIND), type, mode == MAYBE);
+                int kind = sc.fields.at(k, j, F_KIND);
+                valueOut(at, node, kind, sc.fields.at(k, j, F_TYPE), mode == MAYBE, depth);
             }
         }
 
         /** What a pointer leads to; of none a pointer of 0 may be enough. */
-        private void valueOut(int at, int node, int kind, int type, boolean noneIsZero) {
-            if (kind == RECORD) {
-                recordOut(at, node, type);
+        private void valueOut(int at, int node, int kind, int type, boolean noneIsZero,
+                int depth) {
+            if (kind == RECORD && depth < MOST_DEEP) {
+                recordOut(at, node, type, depth + 1);
             } else {
                 int len = tree.nodes.at(node, LEN);
                 if (len > 0 || !noneIsZero) {
@@ -4104,11 +4105,11 @@ public final class WireHouse {
             }
         }
 
-        private void listOut(int at, int list, int kind, int type) {
+        private void listOut(int at, int list, int kind, int type, int depth) {
             int sort = sortOf(kind);
             int size = tree.count(list);
             if (kind == RECORD) {
-                recordsOut(at, list, type, size);
+                recordsOut(at, list, type, size, depth);
                 return;
             }
             int to = claim(wordsOf(sort, size));
@@ -4118,7 +4119,7 @@ public final class WireHouse {
                 if (isNumber(kind)) {
                     putBits(to, i * bitsOf(kind), bitsOf(kind), tree.nodes.num(n, NUM));
                 } else {
-                    valueOut(to + i, n, kind, type, true);
+                    valueOut(to + i, n, kind, type, true, depth);
                 }
                 i++;
             }
@@ -4132,7 +4133,7 @@ public final class WireHouse {
             return to + 1;
         }
 
-        private void recordsOut(int at, int list, int type, int size) {
+        private void recordsOut(int at, int list, int type, int size, int depth) {
             int dataWords = sc.types.at(type, TY_DATA);
             int each = dataWords + sc.types.at(type, TY_POINTERS);
             int from = recordListOut(at, size, dataWords, each - dataWords);
@@ -4143,12 +4144,12 @@ public final class WireHouse {
             }
             to = from;
             for (int n = tree.first(list); n != 0; n = tree.next(n)) {
-                pointersOut(to, n, type);
+                pointersOut(to, n, type, depth + 1);
                 to += each;
             }
         }
 
-        private void mapOut(int at, int map, int k, int j) {
+        private void mapOut(int at, int map, int k, int j, int depth) {
             int keyKind = sc.fields.at(k, j, F_KEY);
             int kind = sc.fields.at(k, j, F_KIND);
             int dataWords = entryData(keyKind, kind);
@@ -4172,7 +4173,7 @@ public final class WireHouse {
                 }
                 if (!isNumber(kind)) {
                     int type = sc.fields.at(k, j, F_TYPE);
-                    valueOut(keyKind == TEXT ? to + 1 : to, n, kind, type, true);
+                    valueOut(keyKind == TEXT ? to + 1 : to, n, kind, type, true, depth);
                 }
                 to += each;
             }
