@@ -735,7 +735,7 @@ public final class WireHouse {
             }
         } else {
             int r = post.arriveAtClient();
-            int code = r < 0 ? 0 : (int) post.bodyAt(r).bigAt(4, 4);
+            int code = r < 0 ? 0 : (int) post.partsAt(r).bigAt(4, 4);
             if (r >= 0 && code == 0 && !takeAnswer(r, post.letters.at(LETTERS, L_TO))) {
                 code = 7;
             }
@@ -780,7 +780,7 @@ public final class WireHouse {
     private boolean takeAnswer(int r, int c) {
         int s = clientSchema(c);
         int j = post.calls.at(r, K_PLACE);
-        Bytes answer = post.bodyAt(r);
+        Bytes answer = post.partsAt(r);
         wire.empty();
         wire.addAll(answer, 8, answer.n - 8);
         int k = schemas[s].calls.at(post.clients.at(c, CL_SERVICE), j, C_OUT);
@@ -4822,10 +4822,11 @@ public final class WireHouse {
         private final Table state = new Table(1, 4, Schema.NODES_EACH + 2);
         final Table clients = new Table(1, CLIENTS, 6);
         final Table calls = new Table(1, KEPT, 5);
-        private final Bytes[] bodies = new Bytes[KEPT];
-        /** Parts of answers, by the calls' rows, and of calls at the server behind them. */
+        /** What is there of answers, by the calls' rows, and of calls at the server behind them. */
         private final Table parts = new Table(1, KEPT + WAITING, 4);
-        private final Bytes[] partTexts = new Bytes[KEPT + WAITING];
+        /** The BODIES that calls sent, then those that come together by parts. */
+        private final Bytes[] bodies = new Bytes[2 * KEPT + WAITING];
+        private final Bytes nowhere = new Bytes(0);
         private final Table pending = new Table(1, WAITING, 4);
         private final Table answers = new Table(1, REMEMBERED, 2);
         private final Bytes[] answerTexts = new Bytes[REMEMBERED];
@@ -4833,12 +4834,6 @@ public final class WireHouse {
         private boolean dividedByNone;
 
         Net() {
-            for (int i = 0; i < KEPT; i++) {
-                bodies[i] = new Bytes(BODY);
-            }
-            for (int i = 0; i < KEPT + WAITING; i++) {
-                partTexts[i] = new Bytes(BODY);
-            }
             for (int i = 0; i < REMEMBERED; i++) {
                 answerTexts[i] = new Bytes(BODY);
             }
@@ -4958,13 +4953,10 @@ public final class WireHouse {
         private boolean gather(int r) {
             int part = letters.at(LETTERS, L_PART);
             int of = letters.at(LETTERS, L_OF);
-            if (r < 0 || r >= partTexts.length) {
-                return false;
-            }
             if (parts.at(r, G_OF) != of) {
                 parts.wipe(r);
                 parts.set(r, G_OF, of);
-                partTexts[r].empty();
+                partsAt(r).empty();
             }
             int mask = G_MASK + (part >> 6);
             long bit = 1L << (part & 63);
@@ -4972,7 +4964,7 @@ public final class WireHouse {
                 parts.set(r, mask, parts.num(r, mask) | bit);
                 parts.set(r, G_GOT, parts.at(r, G_GOT) + 1);
                 int len = letters.at(LETTERS, L_LEN);
-                partTexts[r].lay(part * PART, letterText, LETTERS * PART, len);
+                partsAt(r).lay(part * PART, letterText, LETTERS * PART, len);
             }
             return parts.at(r, G_GOT) == of;
         }
@@ -5020,13 +5012,24 @@ public final class WireHouse {
             return slot;
         }
 
-        /** The BODY that came as a call's, or as the answer of a call. */
-        Bytes bodyAt(int r) {
-            return r >= 0 && r < partTexts.length ? partTexts[r] : letterText;
+        /** A BODY's room, which is made when it is needed first. */
+        private Bytes bodyAt(int i) {
+            if (i < 0 || i >= bodies.length) {
+                return nowhere;
+            }
+            if (bodies[i] == null) {
+                bodies[i] = new Bytes(BODY);
+            }
+            return bodies[i];
+        }
+
+        /** What came together: the answer of a call, or behind these a call at the server. */
+        Bytes partsAt(int r) {
+            return bodyAt(KEPT + r);
         }
 
         Bytes callBody(int slot) {
-            return bodyAt(KEPT + slot);
+            return partsAt(KEPT + slot);
         }
 
         /** Remembers an answer to the call that is DELIVERED, and sends it. */
@@ -5182,12 +5185,12 @@ public final class WireHouse {
             int xid = nextXid(c);
             int made = clients.at(c, CL_MADE);
             int r = c * CALLS + made;
-            if (made >= CALLS || r < 0 || r >= bodies.length) {
+            if (made >= CALLS) {
                 return FULL;
             }
             clients.set(c, CL_MADE, made + 1);
             clients.set(c, CL_NEXT, xid + 1);
-            bodies[r].become(body);
+            bodyAt(r).become(body);
             parts.wipe(r);
             end(r, WAITS, 0);
             calls.set(r, K_SENT, 1);
@@ -5214,10 +5217,10 @@ public final class WireHouse {
             int sent = calls.at(r, K_SENT);
             if (sent >= 4) {
                 end(r, GIVEN_UP, 0);
-            } else if (r >= 0 && r < bodies.length) {
+            } else {
                 calls.set(r, K_SENT, sent + 1);
                 calls.set(r, K_LAST, time);
-                send(SERVER, c, xid, bodies[r]);
+                send(SERVER, c, xid, bodyAt(r));
             }
         }
     }

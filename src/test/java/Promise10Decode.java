@@ -1,0 +1,348 @@
+/** Promise 10: decode with the faults of three formats, ask, number. */
+public final class Promise10Decode {
+    private static final Check C = new Check();
+    private static final String SCHEMA = "enum E { A = 1; B = 7; } record N { } record R { bool b @ 1 = true; int i @ 2; text t @ 3 = \"d\"; R r @ 4; many int l @ 5; many text lt @ 6; many R lr @ 7; map<text, R> m @ 8; map<int, E> me @ 9; one o { text p @ 10; N n @ 11; long j @ 12; R q @ 13; } maybe bytes y @ 14; E e @ 15; }";
+    private static final int R = 2;
+
+    public static void main(String[] args) {
+        C.schema(0, SCHEMA);
+        arguments();
+        streamValues();
+        streamFaults();
+        linearFaults();
+        slottedValues();
+        slottedFaults();
+        slottedWalks();
+        asked();
+        Check.end();
+    }
+
+    private static void arguments() {
+        WireHouse x = C.house;
+        C.load(0, "");
+        Check.due("an empty row", x.decode(0, R, 0, 0, 0), 0);
+        Check.due("no such schema", x.decode(4, R, 0, 0, 0), Check.BAD);
+        Check.due("an enum", x.decode(0, 0, 0, 0, 0), Check.BAD);
+        Check.due("no type", x.decode(0, 3, 0, 0, 0), Check.BAD);
+        Check.due("below 0 of no schema", x.decode(1, -1, 0, 0, 0), Check.BAD);
+        Check.due("no format", x.decode(0, R, 3, 0, 0), Check.BAD);
+        Check.due("no row", x.decode(0, R, 0, 8, 0), Check.BAD);
+        Check.due("no message", x.decode(0, R, 0, 0, 12), Check.BAD);
+        Check.due("no schema there", x.decode(1, 99, 0, 0, 0), Check.NO);
+    }
+
+    private static void good(int format, String hex, String due) {
+        C.load(0, hex);
+        Check.due("decode of " + hex + " is told at", C.house.decode(0, R, format, 0, 0) >= 0 ? C.house.place() : 0, Check.NO);
+        Check.due(hex, C.printed(0), due);
+    }
+
+    private static void bad(int format, String hex, int fault, int place) {
+        C.load(0, hex);
+        C.read(0, 0, "R {i: 77}");
+        C.fault(hex, C.house.decode(0, R, format, 0, 0), fault, place);
+        Check.due("the message stays", C.printed(0), "R{i:77}");
+    }
+
+    private static void streamValues() {
+        good(0, "0800", "R{b:false}");
+        good(0, "0880808080808080808001", "R{}");
+        good(0, "10ffffffff0f 7887800c", "R{i:-1,e:B}");
+        good(0, "10ff808080808080808001", "R{i:127}");
+        good(0, "1a0161 1a0162 1002 1003", "R{i:3,t:\"b\"}");
+        good(0, "1a0164 7801", "R{}");
+        good(0, "2202 1001 2203 1a0161", "R{r:{i:1,t:\"a\"}}");
+        good(0, "2801 2a03 020304 2805 2a00", "R{l:[1,2,3,4,5]}");
+        good(0, "2a00 3200 3200", "R{lt:[\"\",\"\"]}");
+        good(0, "4200", "R{m:<\"\":{}>}");
+        good(0, "4205 0a0161 1200 4206 1202 1001 0a00 4209 0a0161 1202 1002 1801", "R{m:<\"\":{i:1},\"a\":{i:2}>}");
+        good(0, "4208 1202 1001 1202 0800", "R{m:<\"\":{b:false}>}");
+        good(0, "4a00 4a04 0805 1007 4a02 0805", "R{me:<0:A,5:A>}");
+        good(0, "4a07 0801 0a0161 1007", "R{me:<1:B>}");
+        good(0, "520161 6005", "R{j:5}");
+        good(0, "6a021001 6a021a00", "R{q:{i:1,t:\"\"}}");
+        good(0, "6a021001 5a00 6a00", "R{q:{}}");
+        good(0, "7200", "R{y:\"\"}");
+        C.load(0, "1201 ff 2001 800105 f8ffffff0f00");
+        Check.due("unknown: another WIRE, another number", C.house.decode(0, R, 0, 0, 0), 4);
+        C.house.encode(0, 0, 1);
+        Check.due("as they stand", C.hex(1), "1201ff2001800105f8ffffff0f00");
+    }
+
+    private static void streamFaults() {
+        bad(0, "08", 1, 1);
+        bad(0, "0880", 1, 2);
+        bad(0, "80", 1, 1);
+        bad(0, "1a02 61", 1, 3);
+        bad(0, "2203 1a02 61", 1, 5);
+        bad(0, "2202 1a02 61", 1, 4);
+        bad(0, "2a02 0180", 1, 4);
+        bad(0, "1affffffffffffffffff01", 1, 11);
+        bad(0, "f90100000000000000", 1, 9);
+        bad(0, "fd01000000", 1, 5);
+        bad(0, "08 80808080808080808002", 2, 1);
+        bad(0, "0800 ffffffffffffffffffff01", 2, 2);
+        bad(0, "0800 00", 3, 2);
+        bad(0, "07", 3, 0);
+        bad(0, "8080808010 00", 3, 0);
+        bad(0, "0b", 4, 0);
+        bad(0, "0800 0c", 4, 2);
+        bad(0, "0e", 4, 0);
+        bad(0, "0f", 4, 0);
+        bad(0, "1a02 c380 1a02 80c3", 5, 6);
+        bad(0, "3203 eda080", 5, 2);
+        bad(0, "4204 0a02 c328", 5, 4);
+        bad(0, "4a02 0b00", 4, 2);
+        String deep = nested("", 11);
+        C.load(0, deep);
+        Check.due("12 deep", C.house.decode(0, R, 0, 0, 1), 11);
+        bad(0, nested("2200", 11), 6, 22);
+        bad(0, nested("3a00", 11), 6, 22);
+        bad(0, nested("4204 0a00 1200", 11), 6, 26);
+        bad(0, nested("4202 0a00", 11), 6, 22);
+        bad(0, nested("4203 0a0180", 11), 5, 26);
+        bad(0, nested("2201", 11), 1, 24);
+        bad(0, "2a9103" + Check.times("01", 401), 7, 0);
+        C.load(0, "2a8f03" + Check.times("01", 399));
+        Check.due("400 VALUES", C.house.decode(0, R, 0, 0, 1), 400);
+        C.load(0, Check.times("1001", 1000));
+        Check.due("one value, told often", C.house.decode(0, R, 0, 0, 1), 1);
+    }
+
+    /** Bytes within so many records in field 4 of one another. */
+    private static String nested(String hex, int times) {
+        String inner = hex.replace(" ", "");
+        for (int i = 0; i < times; i++) {
+            inner = "22" + String.format("%02x", inner.length() / 2) + inner;
+        }
+        return inner;
+    }
+
+    private static void linearFaults() {
+        // b, i, t, r, l, lt, lr, m, me, o, y, e
+        String t = "00000001 64000000";
+        String zeros = Check.times("00000000", 8);
+        good(1, "00000001 00000002" + t + zeros + "00000001", "R{i:2}");
+        good(1, "00000000 00000000" + t + Check.times("00000000", 6) + "0000000c 0000000000000005 00000000 00000007", "R{b:false,j:5,e:B}");
+        bad(1, "", 1, 0);
+        bad(1, "000000", 1, 3);
+        bad(1, "00000002", 2, 0);
+        bad(1, "00000001 00000000 80000000 64", 1, 13);
+        bad(1, "00000001 00000000 00000002 64", 1, 13);
+        bad(1, "00000001 00000000 00000001 64", 1, 13);
+        bad(1, "00000001 00000000 00000001 64000100", 3, 14);
+        bad(1, "00000001 00000000 00000002 c300 0100", 5, 12);
+        bad(1, "00000001 00000000" + t + "00000003", 2, 16);
+        bad(1, "00000001 00000000" + t + zeros + "00000002", 4, 48);
+        bad(1, "00000001 00000000" + t + zeros + "00000001 00", 10, 52);
+        bad(1, "00000001 00000000" + t + "00000000 00000191", 7, 20);
+        bad(1, "00000001 00000000" + t + "00000000 00000001 00000000 00000190", 7, 28);
+        bad(1, "00000001 00000000" + t + "00000000 ffffffff", 7, 20);
+        bad(1, "00000001 00000000" + t + Check.times("00000000", 6) + "00000001", 8, 40);
+        String map = "00000001 00000000" + t + Check.times("00000000", 5);
+        bad(1, map + "00000002 00000005 00000001 00000005", 9, 48);
+        bad(1, map + "00000002 00000005 00000001 fffffffe", 9, 48);
+        bad(1, map + "00000001 00000005 00000003", 4, 44);
+        map = "00000001 00000000" + t + Check.times("00000000", 4);
+        String rec = "00000001 00000000" + t + zeros + "00000001";
+        bad(1, map + "00000002 00000001 61000000" + rec + "00000001 61000000", 9, 44 + 52);
+        bad(1, map + "00000002 00000001 61000000" + rec + "00000001 61000001", 3, 44 + 52 + 7);
+        StringBuilder deep = new StringBuilder();
+        for (int i = 0; i < 11; i++) {
+            deep.append("00000001 00000000" + t + "00000001");
+        }
+        bad(1, deep + "00000001 00000000" + t + "00000001", 6, 12 * 20);
+        bad(1, deep + "00000001 00000000" + t + "00000002", 2, 12 * 20 - 4);
+        bad(1, "00000001 00000000" + t + "00000000 00000190" + Check.times("00000001", 400) + zeros.substring(16) + "00000001", 7, 0);
+    }
+
+    /** A record R whose words are 0 but for one pointer, and the pointer to it. */
+    private static String root(int pointer, String word) {
+        int data = C.house.type(0, R, 3);
+        int pointers = C.house.type(0, R, 4);
+        return Check.word((long) data << 32 | (long) pointers << 48) + Check.times(Check.word(0), data + pointer)
+            + word + Check.times(Check.word(0), pointers - pointer - 1);
+    }
+
+    private static int wordOf(int pointer) {
+        return 1 + C.house.type(0, R, 3) + pointer;
+    }
+
+    private static int pointer(int field) {
+        return C.house.field(0, R, field, 7);
+    }
+
+    private static long list(int at, int to, int sort, long count) {
+        return 1 | (to - at - 1L) << 2 & 0xffffffffL | (long) sort << 32 | count << 35;
+    }
+
+    private static void slottedValues() {
+        good(2, Check.word(0), "R{}");
+        good(2, Check.word(0xfffffffcL), "R{}");
+        good(2, Check.word(1L << 32) + Check.word(1 | 5L << 32), "R{b:false,i:5}");
+        good(2, Check.word(4L << 2 | 1L << 32) + Check.times(Check.word(-1), 4) + Check.word(1), "R{b:false}");
+        int at = wordOf(pointer(2));
+        int end = 1 + C.house.type(0, R, 3) + C.house.type(0, R, 4);
+        good(2, root(pointer(2), Check.word(list(at, end, 2, 2))) + "6100000000000000", "R{t:\"a\"}");
+        good(2, root(pointer(2), Check.word(list(at, end, 2, 1))) + "0061000000000000", "R{t:\"\"}");
+        at = wordOf(pointer(4));
+        good(2, root(pointer(4), Check.word(list(at, end, 4, 3))) + "0100000002000000" + "ffffffff00000000", "R{l:[1,2,-1]}");
+        good(2, root(pointer(4), Check.word(list(at, end, 4, 0))), "R{}");
+        // a TAG of each of the one's four, with pointers and words of 0
+        String[] due = {"R{p:\"\"}", "R{n:{}}", "R{j:0}", "R{q:{}}"};
+        int tag = C.house.field(0, R, 9, 8);
+        for (int i = 0; i < 4; i++) {
+            good(2, Check.word(1L << 32) + Check.word(i + 1L << tag), due[i]);
+        }
+    }
+
+    private static void slottedFaults() {
+        bad(2, "", 1, 0);
+        bad(2, "00000000000000", 1, 7);
+        bad(2, Check.word(0) + "00", 1, 9);
+        bad(2, Check.word(2), 2, 0);
+        bad(2, Check.word(7), 2, 0);
+        bad(2, Check.word(1), 2, 0);
+        bad(2, Check.word(1L << 32), 3, 0);
+        bad(2, Check.word(4), 3, 0);
+        good(2, Check.word(4) + Check.word(0), "R{}");
+        bad(2, Check.word(-8L & 0xffffffffL), 3, 0);
+        int tag = C.house.field(0, R, 9, 8);
+        bad(2, Check.word(1L << 32) + Check.word(5L << tag), 8, 8);
+        int end = 1 + C.house.type(0, R, 3) + C.house.type(0, R, 4);
+        int p = pointer(2);
+        int at = wordOf(p);
+        bad(2, root(p, Check.word(4)), 2, at * 8);
+        bad(2, root(p, Check.word(list(at, end, 2, 1))), 3, at * 8);
+        bad(2, root(p, Check.word(list(at, end, 0, 1))), 4, at * 8);
+        bad(2, root(p, Check.word(list(at, end, 3, 1))) + Check.word(0), 4, at * 8);
+        bad(2, root(p, Check.word(list(at, end, 2, 0))), 5, at * 8);
+        bad(2, root(p, Check.word(list(at, end, 2, 2))) + Check.word(0x6161), 5, at * 8);
+        bad(2, root(p, Check.word(list(at, end, 2, 2))) + Check.word(0xff), 5, at * 8);
+        p = pointer(3);
+        at = wordOf(p);
+        bad(2, root(p, Check.word(list(at, end, 7, 0))) + Check.word(0), 2, at * 8);
+        p = pointer(6);
+        at = wordOf(p);
+        bad(2, root(p, Check.word(list(at, end, 7, 0))), 3, at * 8);
+        good(2, root(p, Check.word(list(at, end, 7, 0))) + Check.word(2L << 2), "R{lr:[{},{}]}");
+        bad(2, root(p, Check.word(list(at, end, 7, 0))) + Check.word(1), 9, end * 8);
+        bad(2, root(p, Check.word(list(at, end, 7, 1))) + Check.word(1L << 2) + Check.word(0), 9, end * 8);
+        good(2, root(p, Check.word(list(at, end, 7, 1))) + Check.word(1L << 2 | 1L << 32) + Check.word(1), "R{lr:[{b:false}]}");
+        bad(2, root(p, Check.word(list(at, end, 7, 0))) + Check.word(401L << 2), 7, at * 8);
+        bad(2, root(p, Check.word(list(at, end, 7, 0))) + Check.word(0xfffffffcL), 7, at * 8);
+        p = pointer(8);
+        at = wordOf(p);
+        String two = Check.word(list(at, end, 7, 2)) ;
+        good(2, root(p, two) + Check.word(2L << 2 | 1L << 32) + Check.word(1 | 7L << 32) + Check.word(2), "R{me:<1:B,2:0>}");
+        bad(2, root(p, two) + Check.word(2L << 2 | 1L << 32) + Check.word(2) + Check.word(2), 10, at * 8);
+        bad(2, root(p, two) + Check.word(2L << 2 | 1L << 32) + Check.word(2) + Check.word(1), 10, at * 8);
+        p = pointer(7);
+        at = wordOf(p);
+        good(2, root(p, Check.word(list(at, end, 7, 0))) + Check.word(1L << 2), "R{m:<\"\":{}>}");
+        bad(2, root(p, Check.word(list(at, end, 7, 0))) + Check.word(2L << 2), 10, at * 8);
+    }
+
+    private static void slottedWalks() {
+        int data = C.house.type(0, R, 3);
+        int pointers = C.house.type(0, R, 4);
+        int each = data + pointers;
+        int p = pointer(3);
+        String down = Check.times(Check.word(0), data + p)
+            + Check.word((pointers - p - 1L) << 2 | (long) data << 32 | (long) pointers << 48)
+            + Check.times(Check.word(0), pointers - p - 1);
+        String top = Check.word((long) data << 32 | (long) pointers << 48);
+        String last = Check.times(Check.word(0), each);
+        good(2, top + Check.times(down, 11) + last, "R" + Check.times("{r:", 11) + "{" + Check.times("}", 12));
+        bad(2, top + Check.times(down, 12) + last, 6, (1 + 11 * each + data + p) * 8);
+        // a record whose r leads to itself
+        String self = top + Check.times(Check.word(0), data + p)
+            + Check.word((-data - p - 1L) << 2 & 0xffffffffL | (long) data << 32 | (long) pointers << 48)
+            + Check.times(Check.word(0), pointers - p - 1);
+        bad(2, self, 6, (1 + data + p) * 8);
+        // 400 items of numbers may be, 401 are too many; with the field they are LARGE
+        int l = pointer(4);
+        int at = wordOf(l);
+        int end = 1 + each;
+        bad(2, root(l, Check.word(list(at, end, 4, 401))) + Check.times(Check.word(0), 201), 7, at * 8);
+        bad(2, root(l, Check.word(list(at, end, 4, 400))) + Check.times(Check.word(0), 200), 7, 0);
+        // texts: 5 that walk 199 words each, and all the same bytes, are more than 1000 with the root
+        int k = pointer(5);
+        at = wordOf(k);
+        StringBuilder texts = new StringBuilder(root(k, Check.word(list(at, end, 6, 5))));
+        for (int i = 0; i < 5; i++) {
+            texts.append(Check.word(list(end + i, end + 5, 2, 199 * 8)));
+        }
+        texts.append(Check.times(Check.word(0), 199));
+        bad(2, texts.toString(), 7, (end + 4) * 8);
+    }
+
+    private static void asks(String path, int sort, long number) {
+        Check.due(path, C.ask(0, 5, path), sort);
+        Check.due("number of " + path, C.house.number(), number);
+    }
+
+    private static void bytes(String path, String due) {
+        asks(path, 2, due.length());
+        Check.due("bytes of " + path, C.text(5), due);
+    }
+
+    private static void asked() {
+        C.read(0, 0, "R {i: -3, r: {t: \"abc\", lt: [\"x\", \"\"]}, l: [4, 5], lr: [{i: 6}, {}], m: <\"k\": {i: 7}, \"\": {}>, me: <-1: B>, q: {r: {}}, y: \"\\x00\"}");
+        asks("i", 1, -3);
+        asks("b", 1, 1);
+        bytes("t", "d");
+        bytes("r.t", "abc");
+        bytes("r.lt[1]", "");
+        bytes(" r . lt [ 0 ] # remark", "x");
+        bytes("y", "\u0000");
+        asks("r", 3, R);
+        asks("l", 4, 2);
+        Check.due("the row has what came last", C.text(5), "\u0000");
+        asks("l[1]", 1, 5);
+        asks("l[2]", 0, 0);
+        asks("l[-1]", 0, 0);
+        asks("l[9223372036854775807]", 0, 0);
+        asks("lr[1].i", 1, 0);
+        asks("lr[1].l", 4, 0);
+        asks("lr[1].m", 5, 0);
+        asks("lr[1].y", 0, 0);
+        asks("lr[2].l", 0, 0);
+        asks("m", 5, 2);
+        asks("m[\"k\"].i", 1, 7);
+        asks("m[\"\\x6b\"]", 3, R);
+        asks("m[\"z\"].i", 0, 0);
+        asks("me[-1]", 1, 7);
+        asks("me[1]", 0, 0);
+        asks("q.r.e", 1, 1);
+        asks("p", 0, 0);
+        asks("n", 0, 0);
+        asks("r.r.r.r.r.r.r.r.r.r.r.r.r.r.r.i", 0, 0);
+        C.ask(0, 5, "i");
+        C.fault("no NAME", C.ask(0, 5, ""), 2, 0);
+        Check.due("number with a fault", C.house.number(), 0);
+        C.fault("no field", C.ask(0, 5, "x"), 5, 0);
+        C.fault("a one is no field", C.ask(0, 5, "o"), 5, 0);
+        C.fault("no field within", C.ask(0, 5, "r.x"), 5, 2);
+        C.fault("no record", C.ask(0, 5, "i.1"), 5, 1);
+        C.fault("MANY are no record", C.ask(0, 5, "lr.i"), 5, 2);
+        C.fault("no NAME behind .", C.ask(0, 5, "r.1"), 2, 2);
+        C.fault("no items", C.ask(0, 5, "r[1]"), 5, 1);
+        C.fault("no items of an item", C.ask(0, 5, "l[1][1]"), 5, 4);
+        C.fault("STRING of MANY", C.ask(0, 5, "l[\"a\"]"), 5, 1);
+        C.fault("INT of texts", C.ask(0, 5, "m[1]"), 5, 1);
+        C.fault("STRING of numbers", C.ask(0, 5, "me[\"1\"]"), 5, 2);
+        C.fault("2 of the token behind [ first", C.ask(0, 5, "i[x]"), 2, 2);
+        C.fault("1, too", C.ask(0, 5, "i[$"), 1, 2);
+        C.fault("a key beyond", C.ask(0, 5, "me[2147483648]"), 7, 3);
+        C.fault("a key no UTF-8", C.ask(0, 5, "m[\"\\xff\"]"), 7, 2);
+        C.fault("no ]", C.ask(0, 5, "l[1"), 2, 3);
+        C.fault("more", C.ask(0, 5, "i = 1"), 2, 2);
+        C.tape("i");
+        Check.due("no such message", C.house.ask(12, 0), Check.BAD);
+        Check.due("no row", C.house.ask(0, 8), Check.BAD);
+        Check.due("none there", C.house.ask(9, 0), Check.NO);
+        Check.due("the tape stays", C.house.net(4), 1);
+        Check.due("and is empty then", C.house.ask(0, 0) + C.house.net(4), 1);
+    }
+}
