@@ -74,6 +74,12 @@ public final class Promise04AlterEqual {
         c.fault("of 61", c.schema(0, "record R { text x @ 1 = \"" + sixty + "a\"; }"), 1, 24);
         c.fault("a STRING without an end", c.schema(0, "record R { text x @ 1 = \"ab; }"), 1, 24);
         c.fault("a wrong ITEM", c.schema(0, "record R { text x @ 1 = \"\\xFF\"; }"), 1, 24);
+        c.fault("a byte 31 in a STRING", c.schema(0, "record R { text x @ 1 = \"\u001f\"; }"), 1, 24);
+        c.fault("a byte 127 in a STRING", c.schema(0, "record R { text x @ 1 = \"\u007f\"; }"), 1, 24);
+        Check.due("bytes 32 and 126", c.schema(0, "record R { text x @ 1 = \" ~\"; }"), 1);
+        c.fault("half of \\x41", c.schema(0, "record R { text x @ 1 = \"\\x4"), 1, 24);
+        c.fault("a \\ with another byte", c.schema(0, "record R { text x @ 1 = \"\\n\"; }"), 1, 24);
+        Check.due("all letters", c.schema(0, "record AZaz_09 { } record ZAza { } record _ { }"), 3);
         c.fault("a byte 9 in a STRING", c.schema(0, "record R { text x @ 1 = \"\t\"; }"), 1, 24);
         c.fault("a # in a STRING is none of a remark", c.schema(0, "record R { text x @ 1 = \"#\"; } x"), 2, 31);
         c.fault("the end", c.schema(0, "record R {"), 2, 10);

@@ -126,6 +126,7 @@ public final class Promise05Types {
         wrong("6 kept twice", "record R { keep 9, 9; }", 6, "9; }");
         Check.due("2000", c.schema(1, "record R { int y @ 2000; keep 1; }"), 1);
         wrong("6 a constant", "enum E { A = -32769; }", 6, "-");
+        wrong("6 a constant", "enum E { A = 32768; }", 6, "32768");
         Check.due("-32768", c.schema(1, "enum E { A = - 32768; B = 32767; }"), 1);
         wrong("6 a constant's number twice", "enum E { A = 0; B = -0; }", 6, "-0");
         wrong("7 many in a one", "record R { one o { many int x @ 1; } }", 7, "many");

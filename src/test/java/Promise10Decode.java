@@ -14,6 +14,7 @@ public final class Promise10Decode {
         slottedFaults();
         slottedWalks();
         asked();
+        lastText();
         Check.end();
     }
 
@@ -275,6 +276,26 @@ public final class Promise10Decode {
         }
         texts.append(Check.times(Check.word(0), 199));
         bad(2, texts.toString(), 7, (end + 4) * 8);
+    }
+
+    /** A text that is the last thing in a row lacks what follows it. */
+    private static void lastText() {
+        Check c = new Check();
+        c.schema(0, "record L { text t @ 1; }");
+        String[] rows = {"00000003 616263", "00000002 6162 00", "00000002 6162", "00000004 616263", "00000001"};
+        int[] ends = {7, 7, 6, 7, 4};
+        for (int i = 0; i < rows.length; i++) {
+            c.load(0, rows[i]);
+            c.fault(rows[i], c.house.decode(0, 0, 1, 0, 0), 1, ends[i]);
+        }
+        c.load(0, "00000003 616263 00");
+        Check.due("with its 0", c.house.decode(0, 0, 1, 0, 0), 1);
+        c.load(0, "00000004 61626364");
+        Check.due("without one", c.house.decode(0, 0, 1, 0, 0), 1);
+        c.load(0, "80000000 61626364");
+        c.fault("2147483648 bytes", c.house.decode(0, 0, 1, 0, 0), 1, 8);
+        c.load(0, "ffffffff 61626364");
+        c.fault("4294967295 bytes", c.house.decode(0, 0, 1, 0, 0), 1, 8);
     }
 
     private static void asks(String path, int sort, long number) {
