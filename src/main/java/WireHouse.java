@@ -119,12 +119,12 @@ public final class WireHouse {
         return Long.compare(a ^ turn, b ^ turn);
     }
 
-    private final Bytes tape = new Bytes(ROOM);
+    private final Bytes tape;
     private final Bytes[] rows = new Bytes[ROWS];
     private final Schema[] schemas = new Schema[SCHEMAS];
     private final Tree[] messages = new Tree[MESSAGES];
     /** The schema that is read next, and takes the place of one that becomes the next. */
-    private Schema spare = new Schema();
+    private Schema spare;
     private final Lexer lexer;
     private final SchemaReader reader;
     private final Texts texts;
@@ -133,8 +133,8 @@ public final class WireHouse {
     private final Judge judging;
     private final Net post;
     /** Messages that are worked on, and rows that are written, ahead of what they become. */
-    private final Tree work = new Tree(6000, 3 * ROOM), made = new Tree(MOST_VALUES + 2, ROOM);
-    private final Bytes wire = new Bytes(4 * ROOM), body = new Bytes(4 * ROOM);
+    private final Tree work, made = new Tree(MOST_VALUES + 2, ROOM);
+    private final Bytes wire, body = new Bytes(4 * ROOM);
     private int latestPlace = NO;
     /** The place of the latest fault of what was READ. */
     private int wirePlace;
@@ -150,12 +150,21 @@ public final class WireHouse {
         for (int i = 0; i < MESSAGES; i++) {
             messages[i] = new Tree(MOST_VALUES + 2, MOST_BYTES);
         }
-        lexer = new Lexer(tape);
-        reader = new SchemaReader(lexer, spare);
-        texts = new Texts(lexer, spare, work, wire);
-        serial = new Serial(spare, work, wire);
-        slotted = new Slotted(spare, work, wire);
-        judging = new Judge(spare, work);
+        Bytes text = new Bytes(ROOM);
+        Bytes bytes = new Bytes(4 * ROOM);
+        Schema empty = new Schema();
+        Tree tree = new Tree(6000, 3 * ROOM);
+        Lexer tokens = new Lexer(text);
+        tape = text;
+        wire = bytes;
+        spare = empty;
+        work = tree;
+        lexer = tokens;
+        reader = new SchemaReader(tokens, empty);
+        texts = new Texts(tokens, empty, tree, bytes);
+        serial = new Serial(empty, tree, bytes);
+        slotted = new Slotted(empty, tree, bytes);
+        judging = new Judge(empty, tree);
         post = new Net();
     }
 
@@ -2762,7 +2771,7 @@ public final class WireHouse {
         }
 
         /** Whether what stands below two nodes is the same, with unknown fields or without. */
-        static boolean isSameBelow(Tree a, int x, Tree b, int y, boolean strangers, int level) {
+        private static boolean isSameBelow(Tree a, int x, Tree b, int y, boolean strangers, int level) {
             int n = a.nodes.at(x, HEAD);
             int m = b.nodes.at(y, HEAD);
             while (n != 0 && m != 0) {
