@@ -77,6 +77,8 @@ public final class Promise04AlterEqual {
         c.fault("a byte 31 in a STRING", c.schema(0, "record R { text x @ 1 = \"\u001f\"; }"), 1, 24);
         c.fault("a byte 127 in a STRING", c.schema(0, "record R { text x @ 1 = \"\u007f\"; }"), 1, 24);
         Check.due("bytes 32 and 126", c.schema(0, "record R { text x @ 1 = \" ~\"; }"), 1);
+        c.fault("no digit", c.schema(0, "record R { text x @ 1 = \"\\x4g\"; }"), 1, 24);
+        c.fault("no digit", c.schema(0, "record R { text x @ 1 = \"\\xg4\"; }"), 1, 24);
         c.fault("half of \\x41", c.schema(0, "record R { text x @ 1 = \"\\x4"), 1, 24);
         c.fault("a \\ with another byte", c.schema(0, "record R { text x @ 1 = \"\\n\"; }"), 1, 24);
         Check.due("all letters", c.schema(0, "record AZaz_09 { } record ZAza { } record _ { }"), 3);

@@ -35,6 +35,17 @@ public final class Promise07Describe {
         Check.due("many numbers", C.schema(2, keeps.append(";}").toString()), 1);
         Check.due("no room for " + keeps.length(), x.describe(2, 2), Check.FULL);
         Check.due("the row stays", C.text(2), due);
+        StringBuilder exactly = new StringBuilder("record R{keep 1");
+        for (int i = 2; i <= 680; i++) {
+            exactly.append(',').append(i);
+        }
+        C.schema(2, exactly.append(";}").toString());
+        int n = x.describe(2, 2);
+        // what lacks up to 4000, and one more, comes as the record's NAME
+        C.schema(2, exactly.toString().replace("R{", Check.times("R", 1 + 4000 - n) + "{"));
+        Check.due("4000 bytes", x.describe(2, 2), 4000);
+        C.schema(2, exactly.toString().replace("R{", Check.times("R", 2 + 4000 - n) + "{"));
+        Check.due("4001 bytes", x.describe(2, 2), Check.FULL);
     }
 
     private static long fnv(String text) {

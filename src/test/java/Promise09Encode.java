@@ -115,6 +115,9 @@ public final class Promise09Encode {
         C.put(0, "l[249] = {}");
         Check.due("4004 bytes", C.house.encode(0, 1, 0), Check.FULL);
         Check.due("the row stays", C.house.size(0), 3988);
+        C.schema(0, "record Q { long a @ 1; long b @ 2; } record R { many Q l @ 1; int a @ 2; int b @ 3; int c @ 4; }");
+        C.read(0, 0, "R {l: [{}" + Check.times(",{}", 248) + "]}");
+        Check.due("4000 bytes", C.house.encode(0, 1, 0), 4000);
     }
 
     private static void slotted() {
@@ -150,6 +153,14 @@ public final class Promise09Encode {
             + Check.word(0xfffffffcL) + none);
         wire(2, "R {k: [\"\", \"a\"]}", root + Check.times(none, 9) + Check.word(1 | 6L << 32 | 2L << 35)
             + none + Check.word(1 | 2L << 32 | 2L << 35) + "6100000000000000");
+        C.schema(0, "record R { many bool l @ 1; many ulong u @ 2; map<ulong, bool> m @ 3; }");
+        String three = Check.word(3L << 48);
+        wire(2, "R {l: [true" + Check.times(",true", 63) + "]}", three + Check.word(1 | 2L << 2 | 1L << 32 | 64L << 35)
+            + none + none + Check.word(-1));
+        wire(2, "R {l: [true" + Check.times(",true", 64) + "]}", three + Check.word(1 | 2L << 2 | 1L << 32 | 65L << 35)
+            + none + none + Check.word(-1) + Check.word(1));
+        wire(2, "R {m: <1: true, 2: false>}", three + none + none + Check.word(1 | 7L << 32 | 4L << 35)
+            + Check.word(2L << 2 | 2L << 32) + Check.word(1) + Check.word(1) + Check.word(2) + none);
         C.schema(0, "record Q { long a @ 1; long b @ 2; } record R { many Q l @ 1; }");
         C.read(0, 0, "R {l: [{}" + Check.times(",{}", 247) + "]}");
         Check.due("499 words", C.house.encode(0, 2, 0), (3 + 248 * 2) * 8);

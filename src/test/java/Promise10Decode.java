@@ -15,6 +15,10 @@ public final class Promise10Decode {
         slottedWalks();
         asked();
         lastText();
+        keysWithoutSign();
+        oneThenUnknown();
+        shortEntries();
+        walked();
         Check.end();
     }
 
@@ -296,6 +300,68 @@ public final class Promise10Decode {
         c.fault("2147483648 bytes", c.house.decode(0, 0, 1, 0, 0), 1, 8);
         c.load(0, "ffffffff 61626364");
         c.fault("4294967295 bytes", c.house.decode(0, 0, 1, 0, 0), 1, 8);
+    }
+
+    /** Keys of ulong and fixlong go by size without sign. */
+    private static void keysWithoutSign() {
+        Check c = new Check();
+        for (String kind : new String[] {"ulong", "fixlong"}) {
+            c.schema(0, "record L { map<" + kind + ", bool> m @ 1; }");
+            String one = kind.equals("ulong") ? "0801" : "090100000000000000";
+            String most = kind.equals("ulong") ? "08ffffffffffffffffff01" : "09ffffffffffffffff";
+            String head = kind.equals("ulong") ? "0a0b" : "0a09";
+            c.load(0, head + most + (kind.equals("ulong") ? "0a02" : "0a09") + one);
+            Check.due("a STREAM in another order", c.house.decode(0, 0, 0, 0, 0), 5);
+            Check.due("by size", c.printed(0), "L{m:<1:false,18446744073709551615:false>}");
+            for (int format = 1; format < 3; format++) {
+                c.house.encode(0, format, 1);
+                Check.due("in order", c.house.decode(0, 0, format, 1, 1), 5);
+                Check.due("the same", c.house.same(0, 1), 1);
+            }
+            c.load(1, "00000002 ffffffffffffffff 00000000 0000000000000001 00000000");
+            c.fault("LINEAR in another order", c.house.decode(0, 0, 1, 1, 1), 9, 16);
+        }
+        c.schema(0, "record L { map<long, bool> m @ 1; }");
+        c.load(1, "00000002 ffffffffffffffff 00000000 0000000000000001 00000000");
+        Check.due("of long with sign", c.house.decode(0, 0, 1, 1, 1), 5);
+    }
+
+    /** What comes behind a field of a one that went is kept. */
+    private static void oneThenUnknown() {
+        Check c = new Check();
+        c.schema(0, "record L { one o { int a @ 1; int b @ 2; } many int l @ 3; }");
+        c.load(0, "1002 0801 2005 2006");
+        Check.due("b, then a, and two unknown ones", c.house.decode(0, 0, 0, 0, 0), 3);
+        c.house.encode(0, 0, 1);
+        Check.due("all of them", c.hex(1), "080120052006");
+    }
+
+    /** Records of a MAP with fewer words than their LAYOUT has. */
+    private static void shortEntries() {
+        Check c = new Check();
+        c.schema(0, "record N { } record L { map<int, text> m @ 1; map<text, N> t @ 2; }");
+        String top = Check.word(2L << 48);
+        c.load(0, top + Check.word(list(1, 3, 7, 2)) + Check.word(0) + Check.word(2L << 2 | 1L << 32) + Check.word(1) + Check.word(2));
+        Check.due("without pointers", c.house.decode(0, 1, 2, 0, 0), 5);
+        Check.due("no bytes", c.printed(0), "L{m:<1:\"\",2:\"\">}");
+        c.load(0, top + Check.word(0) + Check.word(list(2, 3, 7, 0)) + Check.word(1L << 2) + Check.word(2) + Check.word(3));
+        Check.due("without anything", c.house.decode(0, 1, 2, 0, 0), 3);
+        Check.due("no bytes, an empty record", c.printed(0), "L{t:<\"\":{}>}");
+    }
+
+    /** 1000 words may be WALKED: three by the top, and those of three records that are one. */
+    private static void walked() {
+        Check c = new Check();
+        c.schema(0, "record L { L a @ 1; L b @ 2; L c @ 3; }");
+        for (int last = 333; last <= 334; last++) {
+            c.load(0, Check.word(3L << 48) + Check.word(2L << 2 | 332L << 32) + Check.word(1L << 2 | 332L << 32)
+                + Check.word((long) last << 32) + Check.times(Check.word(0), 334));
+            if (last == 333) {
+                Check.due("1000 words", c.house.decode(0, 0, 2, 0, 0), 3);
+            } else {
+                c.fault("1001 words", c.house.decode(0, 0, 2, 0, 0), 7, 24);
+            }
+        }
     }
 
     private static void asks(String path, int sort, long number) {

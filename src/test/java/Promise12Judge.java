@@ -48,6 +48,10 @@ public final class Promise12Judge {
         C.read(0, 1, "R {l: [{}]}");
         Check.due("unknown fields do not count", C.house.differ(0, 1), 0);
         Check.due("but they are not the same", C.house.same(0, 1), 0);
+        Check.due("the other way", C.house.differ(1, 0), 0);
+        C.load(0, "1a02 7803");
+        C.house.decode(0, 1, 0, 0, 1);
+        Check.due("other unknown fields", C.house.differ(0, 1), 0);
         C.read(0, 2, "N {}");
         differ("R {i: 1}", "R {i: 2}", "i");
         Check.due("of another record", C.house.differ(0, 2), Check.NO);
@@ -198,6 +202,10 @@ public final class Promise12Judge {
         kind(SLOTTED, "many int", "many text", BREAKS);
         kind(SLOTTED, "many int", "many uint", LOSES);
         kind(SLOTTED, "many N", "N", BREAKS);
+        kind(SLOTTED, "N", "many N", BREAKS);
+        kind(SLOTTED, "text", "many text", BREAKS);
+        kind(SLOTTED, "N", "map<int, N>", BREAKS);
+        kind(SLOTTED, "many text", "many text", ALIKE);
         kind(SLOTTED, "map<int, long>", "map<zint, ulong>", LOSES);
         kind(SLOTTED, "map<int, text>", "many N", BREAKS);
         judge(SLOTTED, "one o { int a @ 7; text b @ 6; }", "one o { int a @ 7; text b @ 6; N c @ 8; }", ALIKE, 0);

@@ -171,6 +171,44 @@ public final class Promise14Letters {
         Check.due("zint", x.number(), -2147483648L);
         Check.due("exps", answer(6, "A {x: 3}", "l"), -3000 - 100 + 10 + 1 + 1);
         Check.due("exps", answer(6, "A {x: 4}", "l"), -3000 - 100 + 10 + 1 - 1);
+        Check.due("schema", c.schema(0, "record A { int x @ 1; } record B { long l @ 1; } service S { call k (A) B @ 1 { out.l = (in.x < 3) + (in.x <= 3) * 10 + (in.x > 3) * 100 + (in.x >= 3) * 1000 + (in.x == 3) * 10000 + (in.x != 3) * 100000; } }"), 2);
+        x.server(0, 0, 0);
+        x.client(0, 0, 0);
+        Check.due("below", answer(0, "A {x: 2}", "l"), 100011);
+        Check.due("the same", answer(0, "A {x: 3}", "l"), 11010);
+        Check.due("above", answer(0, "A {x: 4}", "l"), 101100);
+        largeThere();
+    }
+
+    /** What is bytes to a client is a LARGE list to the server, and the other way. */
+    private static void largeThere() {
+        String bytes = "record A { bytes l @ 1; } record B { maybe int l @ 1; } service S { call k (A) B @ 1 { out.l = 5; } }";
+        String list = "record A { many bool l @ 1; } record B { text l @ 1; } service S { call k (A) B @ 1 { } }";
+        c.schema(0, list);
+        c.schema(1, bytes);
+        x.server(0, 0, 0);
+        x.client(0, 1, 0);
+        c.read(1, 0, "A {}");
+        c.put(0, "l = \"" + Check.times("\\x01", 58) + "\"");
+        Check.due("58 items", call(0, 0, 0, 1), 0);
+        // 400 items and the field are 401 VALUES
+        c.load(0, "0a9003" + Check.times("01", 400));
+        Check.due("400 bytes", x.decode(1, 0, 0, 0, 0), 1);
+        Check.due("LARGE", call(0, 0, 0, 1), 3);
+        c.load(0, "0a8f03" + Check.times("01", 399));
+        x.decode(1, 0, 0, 0, 0);
+        Check.due("not LARGE", call(0, 0, 0, 1), 0);
+        // the first call of the first client gets a 5, which it would read as how many bytes a text has
+        c.schema(0, "record A { } record B { int l @ 1; } service S { call k (A) B @ 1 { out.l = 5; } }");
+        c.schema(1, "record A { } record B { text l @ 1; } service S { call k (A) B @ 1 { } }");
+        x.server(0, 0, 1);
+        x.client(0, 1, 0);
+        c.read(1, 0, "A {}");
+        Check.due("the first call", x.invoke(0, 0, 0), 0);
+        x.deliver(0);
+        x.deliver(0);
+        Check.due("FAILED", x.outcome(0, 0, 0), 2);
+        Check.due("by 7", x.outcome(0, 0, 1), 7);
     }
 
     private static void big(int m, int bytes) {
