@@ -2,7 +2,7 @@
 
     python3 runs.py SORT FIRST COUNT [LIMIT] > FILE
 
-SORT is mixed, limits or schemas; FIRST and COUNT are seeds; a run ends behind LIMIT calls (with it, rows are
+SORT is mixed, limits, schemas or rooms; FIRST and COUNT are seeds; a run ends behind LIMIT calls (with it, rows are
 looked at here and there, else byte by byte). From the project's root, with the classes compiled to OUT:
 
     java -cp OUT RunsOfTheModel FILE
@@ -999,7 +999,262 @@ class Schemas(Run):
             s.call('place')
             if v >= 0:
                 s.probe_schema(0)
-KINDS_OF_RUNS = {'mixed': (Run, 60), 'limits': (Limits, 40), 'schemas': (Schemas, 40)}
+class Rooms(Limits):
+    """Rows that cost a reader much room, though what they tell is neither LARGE nor DEEP."""
+
+    def wide(s):
+        """A schema of records with many fields, of which rows tell few."""
+        r = s.r
+
+        def number(name, num, inone=False):
+            t = r.choice(KINDW[:9] + ['E'])
+            if inone:
+                return '%s %s @ %d;' % (t, name, num)
+            m = r.random()
+            if m < 0.15:
+                return 'maybe %s %s @ %d;' % (t, name, num)
+            v = ''
+            if m < 0.5:
+                v = ' = ' + {'bool': 'true', 'E': 'B'}.get(t, str(r.choice([1, 7, 100])))
+            return '%s %s @ %d%s;' % (t, name, num, v)
+
+        def string(name, num):
+            return r.choice(['text %s @ %d = "abc";', 'text %s @ %d;', 'bytes %s @ %d = "xy";', 'maybe text %s @ %d;', 'many text %s @ %d;', 'many bool %s @ %d;', 'many long %s @ %d;', 'map<int, bool> %s @ %d;', 'map<text, E> %s @ %d;', 'maybe bytes %s @ %d;']) % (name, num)
+
+        def record(name, share, many):
+            nums = r.sample(range(1, 41), 24)
+            parts = []
+            i = 0
+            while i < many:
+                if r.random() < 0.1 and i + 2 <= many:
+                    parts.append('one o%d { %s %s }' % (i, number('f%d' % i, nums[i], True), r.choice(['text f%d @ %d;', 'W f%d @ %d;', 'V f%d @ %d;']) % (i + 1, nums[i + 1])))
+                    i += 2
+                elif r.random() < share:
+                    parts.append(number('f%d' % i, nums[i]))
+                    i += 1
+                elif r.random() < 0.5:
+                    parts.append(string('f%d' % i, nums[i]))
+                    i += 1
+                else:
+                    parts.append(r.choice(['many W f%d @ %d;', 'many V f%d @ %d;', 'map<int, W> f%d @ %d;', 'map<text, V> f%d @ %d;', 'V f%d @ %d;', 'W f%d @ %d;', 'many N f%d @ %d;', 'map<long, N> f%d @ %d;']) % (i, nums[i]))
+                    i += 1
+            return 'record %s { %s }' % (name, ' '.join(parts))
+        t = 'enum E { A = 3; B = -4; } record N { } '
+        t += record('W', 1.0, 24) + ' ' + record('V', 0.6, r.randint(10, 24)) + ' ' + record('Q', 0.2, r.randint(5, 24))
+        t += ' service S { cell a; ' + ' '.join('call c%d (%s) N @ %d { a = a + 1; }' % (i, x, i) for i, x in enumerate('WVQ')) + ' }'
+        return t
+
+    def graph(s, S, k):
+        """A SLOTTED row whose pointers lead to objects of their sorts, shared and in rings."""
+        r = s.r
+        T = S.types[k]
+        objs = []
+        pos = 1
+        few = r.choice([0, 0, 1, 3])
+
+        def shape(t):
+            D, P = (S.types[t].D, S.types[t].P)
+            z = r.random()
+            if z < 0.3:
+                return (0, 0)
+            if z < 0.45:
+                return (D, 0)
+            if z < 0.6:
+                return (0, P)
+            return (D, P)
+
+        def put(sort, t, F, D, P, n, size):
+            nonlocal pos
+            if pos + size <= 495:
+                objs.append((pos, sort, t, F, D, P, n))
+                pos += size
+        put('r', k, None, T.D, T.P, 1, T.D + T.P)
+        want = [(t, f) for t in range(len(S.types)) if S.types[t].rec for f in S.types[t].fields if not isnum(f.kind) or f.mode in 'NP']
+        r.shuffle(want)
+        for t, f in want[:r.choice([3, 10, 40])]:
+            if f.mode == 'N' and isnum(f.kind):
+                n = r.choice([1, 5, 64, 100])
+                put('l', t, f, 0, 0, n, (n * BITS[f.kind] + 63) // 64)
+            elif f.mode == 'N' and f.kind != 12:
+                n = r.choice([1, 5, 30])
+                put('t', t, f, 0, 0, n, n)
+            elif f.mode == 'N':
+                D, P = shape(f.t)
+                n = r.choice([1, 3, 20, 100, 250, 390])
+                put('R', f.t, f, D, P, n, 1 + n * (D + P))
+            elif f.mode == 'P':
+                n = r.choice([1, 2, 5, 30])
+                D, P = entrysize(f)
+                put('m', t, f, D, P, n, 1 + n * (D + P))
+            elif f.kind == 12:
+                D, P = shape(f.t)
+                put('r', f.t, f, D, P, 1, D + P)
+        for w in (0, 1, 2):
+            put('s', None, None, 0, 0, r.choice([1, 4, 9, 20]), 3)
+        words = [0] * pos
+
+        def rp(p, o):
+            return (o[0] - p - 1 & 1073741823) << 2 | o[4] << 32 | o[5] << 48
+
+        def lp(p, o, sort, n):
+            return 1 | (o[0] - p - 1 & 1073741823) << 2 | sort << 32 | n << 35
+
+        def lead(p, f):
+            """A word of a pointer for a field at a place."""
+            if r.random() < 0.25:
+                return 0
+            if f.mode == 'N' or f.mode == 'P':
+                c = [o for o in objs if o[3] is f]
+                if not c:
+                    c = [o for o in objs if o[1] == 'R' and o[2] == f.t and f.mode == 'N' and f.kind == 12]
+                if not c:
+                    return 0
+                o = r.choice(c)
+                if o[1] in 'Rm':
+                    return lp(p, o, 7, o[6] * (o[4] + o[5]))
+                return lp(p, o, {1: 1, 16: 3, 32: 4, 64: 5}[BITS[f.kind]] if isnum(f.kind) else 6, o[6])
+            return one(p, f.kind, f.t)
+
+        def one(p, kind, t):
+            if r.random() < 0.2:
+                return 0
+            if kind == 12:
+                c = [o for o in objs if o[1] == 'r' and o[2] == t]
+                return rp(p, r.choice(c)) if c else (1073741823 << 2)
+            c = [o for o in objs if o[1] == 's']
+            return lp(p, r.choice(c), 2, r.choice([1, 1, 4, 9])) if c else 0
+
+        def fill(at, t, D, P):
+            for i in range(D):
+                words[at + i] = r.choice([0, 0, 0, 0, 1 << r.randrange(64), r.getrandbits(64) if few else 0])
+            T2 = S.types[t]
+            for f in T2.fields:
+                if f.ptr is not None and f.ptr < P and (f.one is None or r.random() < 0.5):
+                    words[at + D + f.ptr] = lead(at + D + f.ptr, f)
+                if f.one is not None and r.random() < 0.5:
+                    tag = f.flag
+                    if tag // 64 < D:
+                        words[at + tag // 64] &= ~(65535 << tag % 64)
+                        words[at + tag // 64] |= r.choice([0, 1, 2]) << tag % 64
+        for o in objs:
+            at, sort, t, f, D, P, n = o
+            if sort == 'r':
+                fill(at, t, D, P)
+            elif sort == 'R':
+                words[at] = n << 2 | D << 32 | P << 48
+                for i in range(n):
+                    fill(at + 1 + i * (D + P), t, D, P)
+            elif sort == 'm':
+                words[at] = n << 2 | D << 32 | P << 48
+                for i in range(n):
+                    b = at + 1 + i * (D + P)
+                    x = 0
+                    if isnum(f.keykind):
+                        words[b] = i
+                    else:
+                        c = [q for q in objs if q[1] == 's']
+                        x = 1
+                        if c and i:
+                            words[b + D] = lp(b + D, c[min(len(c) - 1, i - 1)], 2, 9)
+                    if not isnum(f.kind):
+                        words[b + D + x] = one(b + D + x, f.kind, f.t)
+            elif sort == 't':
+                for i in range(n):
+                    words[at + i] = one(at + i, f.kind, f.t)
+            elif sort == 'l':
+                for i in range((n * BITS[f.kind] + 63) // 64):
+                    words[at + i] = r.getrandbits(64)
+            else:
+                x = 7 + objs.index(o) % 3
+                words[at] = r.choice([0, 97, 24930 << 40])
+                words[at + 1] = 0
+        top = objs[0]
+        words[0] = rp(0, top)
+        return b''.join(struct.pack('<Q', x & (1 << 64) - 1) for x in words)
+
+    def wasteful(s, S, k):
+        """A STREAM that tells one thing after another again."""
+        r = s.r
+        T = S.types[k]
+        b = b''
+        top = r.choice([100, 1000, 3900])
+        while len(b) < top:
+            f = r.choice(T.fields)
+            n = r.choice([1, 1, 30])
+            if isnum(f.kind) and f.mode in 'SM':
+                w = WIRE[f.kind]
+                one = varint(f.num.v * 8 + w) + (varint(r.choice([0, 1, 3, 7, 100])) if w == 0 else struct.pack('<q', r.choice([0, 1, 7]))[:8 if w == 1 else 4])
+            elif isnum(f.kind) and f.mode == 'N':
+                one = varint(f.num.v * 8 + 2) + varint(0 if r.random() < 0.9 else 8) + (b'' if r.random() < 0.9 else bytes(8))
+                one = varint(f.num.v * 8 + 2) + b'\0'
+            elif f.mode == 'P':
+                one = varint(f.num.v * 8 + 2) + r.choice([b'\0', b'\0', b'\x02\x12\0' if not isnum(f.kind) else b'\0'])
+            elif f.mode == 'N':
+                one = varint(f.num.v * 8 + 2) + b'\0'
+                n = 1
+                if r.random() < 0.9:
+                    continue
+            elif f.kind == 12:
+                one = varint(f.num.v * 8 + 2) + b'\0'
+            else:
+                one = varint(f.num.v * 8 + 2) + r.choice([b'\0', b'\3abc', b'\2xy', b'\1z'])
+            b += one * n
+        return b[:4000]
+
+    def play(s, steps):
+        r = s.r
+        w = s.w
+        for _ in range(steps):
+            t = s.wide()
+            if len(t) > 4000:
+                continue
+            s.text(t)
+            v = s.call('schema', 0)
+            s.call('place')
+            assert v >= 0, t
+            S = w.sc[0]
+            f0 = r.randrange(3)
+            s.call('server', 0, 0, f0)
+            s.call('client', 0, 0, 0)
+            for _ in range(6):
+                k = r.choice([2, 3, 4, 4, 4])
+                f = r.choice([0, 2, 2, 2])
+                if r.random() < 0.3:
+                    s.text(s.msgtext(S, k))
+                    v = s.call('read', 0, 1)
+                    s.call('place')
+                else:
+                    s.rawload(s.graph(S, k) if f == 2 else s.wasteful(S, k), 0)
+                    v = s.call('decode', 0, k, f, 0, 1)
+                    s.call('place')
+                if v >= 0:
+                    s.probe_msg(1)
+                    for g in range(3):
+                        if s.call('encode', 1, g, 1 + g) >= 0:
+                            s.call('decode', 0, k, g, 1 + g, 2)
+                            s.call('place')
+                            s.call('same', 1, 2)
+                    s.call('merge', 2, 1)
+                    s.call('told', 2, 2)
+                    s.call('differ', 1, 2)
+                    if s.call('invoke', 0, k - 2, 1) >= 0:
+                        while w.letters:
+                            s.call('deliver', 0)
+                        s.call('cell', 0)
+                        s.call('outcome', 0, w.xid[0] - 1, 0)
+
+def entrysize(F):
+    """Data words and pointers of a MAP's records."""
+    bits = 0
+    P = 0
+    for kind in (F.keykind, F.kind):
+        if isnum(kind):
+            n = BITS[kind]
+            bits = (bits + n - 1) // n * n + n
+        else:
+            P += 1
+    return ((bits + 63) // 64, P)
+KINDS_OF_RUNS = {'mixed': (Run, 60), 'limits': (Limits, 40), 'schemas': (Schemas, 40), 'rooms': (Rooms, 10)}
 
 def lines(sort, first, count, limit):
     cls, steps = KINDS_OF_RUNS[sort]

@@ -1462,6 +1462,11 @@ public final class WireHouse {
                 && fields.at(k, j, F_KIND) != RECORD;
         }
 
+        /** Whether a number is a field's DEFAULT. */
+        boolean isDefault(int k, int j, long v) {
+            return isPlain(k, j) && fields.num(k, j, F_DEFAULT) == v;
+        }
+
         /** Whether a field is a record that is there or not. */
         boolean isRecordField(int k, int j) {
             return fields.at(k, j, F_MODE) <= MAYBE && fields.at(k, j, F_KIND) == RECORD;
@@ -2632,8 +2637,11 @@ public final class WireHouse {
         }
 
         void setNumber(Schema sc, int k, int j, int rec, long v) {
-            nodes.set(come(sc, k, j, rec), NUM, v);
-            settle(sc, k, j, rec);
+            if (sc.isDefault(k, j, v)) {
+                leave(rec, sc.fields.at(k, j, F_RANK));
+            } else {
+                nodes.set(come(sc, k, j, rec), NUM, v);
+            }
         }
 
         void setString(int node, Bytes from, int off, int len) {
@@ -4286,9 +4294,11 @@ public final class WireHouse {
             }
             for (int j = 0; j < sc.fieldCount(k) && fault == 0; j++) {
                 if (sc.fields.at(k, j, F_PLACE) >= 0 && isFlagged(from, dataWords, k, j)) {
-                    int n = tree.come(sc, k, j, rec);
-                    tree.nodes.set(n, NUM, numberAt(from, dataWords, k, j));
-                    tree.settle(sc, k, j, rec);
+                    long v = numberAt(from, dataWords, k, j);
+                    // records without words cost a row nothing: a node only for what is SET
+                    if (!sc.isDefault(k, j, v)) {
+                        tree.nodes.set(tree.come(sc, k, j, rec), NUM, v);
+                    }
                 }
             }
             for (int p = 0; p < sc.types.at(k, TY_POINTERS) && fault == 0; p++) {

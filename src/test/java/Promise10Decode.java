@@ -19,6 +19,8 @@ public final class Promise10Decode {
         oneThenUnknown();
         shortEntries();
         walked();
+        wideRecords();
+        nothingSet();
         Check.end();
     }
 
@@ -362,6 +364,75 @@ public final class Promise10Decode {
                 c.fault("1001 words", c.house.decode(0, 0, 2, 0, 0), 7, 24);
             }
         }
+    }
+
+    private static final String WIDE = "record Z { " + fields("bool", 1, 8, "true") + fields("int", 9, 8, "7") + fields("ulong", 17, 8, "9") + "} record Q { many Z a @ 1; map<int, Z> m @ 2; map<text, Z> t @ 3; many Q q @ 4; text s @ 5 = \"abc\"; many bool b @ 6; } ";
+
+    private static String fields(String type, int first, int count, String value) {
+        StringBuilder text = new StringBuilder();
+        for (int i = first; i < first + count; i++) {
+            text.append(type + " f" + i + " @ " + i + " = " + value + "; ");
+        }
+        return text.toString();
+    }
+
+    /** Many records of 24 fields, none of which is SET: they are LARGE by their VALUES alone. */
+    private static void wideRecords() {
+        Check c = new Check();
+        c.schema(0, WIDE);
+        String top = Check.word(1L << 48) + Check.word(list(1, 2, 7, 0));
+        for (int n : new int[] {1, 248, 249, 250, 399}) {
+            c.load(0, top + Check.word((long) n << 2));
+            Check.due(n + " records without words", c.house.decode(0, 1, 2, 0, 0), n + 1);
+            Check.due("their field and they are SET", c.house.told(0, 2), n + 1);
+            Check.due("in text", c.printed(0), "Q{a:[{}" + Check.times(",{}", n - 1) + "]}");
+        }
+        c.load(0, top + Check.word(400L << 2));
+        c.fault("401 VALUES", c.house.decode(0, 1, 2, 0, 0), 7, 0);
+        c.load(0, top + Check.word(401L << 2));
+        c.fault("401 items", c.house.decode(0, 1, 2, 0, 0), 7, 8);
+        // a word each of zeros: still their DEFAULTS
+        c.load(0, Check.word(1L << 48) + Check.word(list(1, 2, 7, 390)) + Check.word(390L << 2 | 1L << 32) + Check.times(Check.word(0), 390));
+        Check.due("390 records of a word", c.house.decode(0, 1, 2, 0, 0), 391);
+        // the last word is that of a fault, which comes ahead of LARGE
+        c.load(0, Check.word(4L << 48) + Check.word(list(1, 5, 7, 0)) + Check.word(0) + Check.word(0) + Check.word(2) + Check.word(399L << 2));
+        c.fault("behind all of them", c.house.decode(0, 1, 2, 0, 0), 2, 32);
+        // keys 0 .. 198, and items that are empty records
+        StringBuilder map = new StringBuilder(Check.word(2L << 48) + Check.word(0) + Check.word(list(2, 3, 7, 398)) + Check.word(199L << 2 | 1L << 32 | 1L << 48));
+        for (int i = 0; i < 199; i++) {
+            map.append(Check.word(i) + Check.word(0));
+        }
+        c.load(0, map.toString());
+        Check.due("199 items of a MAP", c.house.decode(0, 1, 2, 0, 0), 399);
+        // one record of 24 fields that are SET
+        c.load(0, Check.word(1L << 48) + Check.word(list(1, 2, 7, 13)) + Check.word(1L << 2 | 13L << 32) + Check.word(-1) + Check.times(Check.word(5L << 32 | 5), 12));
+        Check.due("all SET", c.house.decode(0, 1, 2, 0, 0), 26);
+    }
+
+    /** What has its DEFAULT or no item behind a pointer is not SET, however often it is come to. */
+    private static void nothingSet() {
+        Check c = new Check();
+        c.schema(0, WIDE);
+        // records of 6 pointers, of which the fifth leads to the text, the sixth to a list of none
+        StringBuilder row = new StringBuilder(Check.word(4L << 48) + Check.word(0) + Check.word(0) + Check.word(0) + Check.word(list(4, 5, 7, 70 * 6)) + Check.word(70L << 2 | 6L << 48));
+        int end = 6 + 70 * 6;
+        for (int i = 0; i < 70; i++) {
+            int at = 6 + 6 * i;
+            row.append(Check.times(Check.word(0), 4) + Check.word(list(at + 4, end, 2, 4)) + Check.word(list(at + 5, end, 1, 0)));
+        }
+        c.load(0, row + Check.word(0x636261));
+        Check.due("70 records without anything SET", c.house.decode(0, 1, 2, 0, 0), 71);
+        Check.due("no BYTES", c.house.told(0, 3), 0);
+        // a one's fields that take one another away, in a STREAM
+        c.schema(0, "record Q { one o { bool a @ 1; int b @ 2; text t @ 3; Q q @ 4; } text s @ 5 = \"abc\"; map<int, Q> m @ 6; many bool l @ 7; }");
+        c.load(0, Check.times("0801 1002 1a0178 2200", 363) + "0800 2a03616263");
+        Check.due("the last of a one", c.house.decode(0, 0, 0, 0, 0), 1);
+        c.load(0, Check.times("3200", 2000));
+        Check.due("2000 times one key", c.house.decode(0, 0, 0, 0, 0), 3);
+        c.load(0, Check.times("3204 1202 2200", 600) + Check.times("2a03616263", 80));
+        Check.due("600 items of one key", c.house.decode(0, 0, 0, 0, 0), 4);
+        c.load(0, "3ae31e" + Check.times("01", 3939));
+        c.fault("3939 items", c.house.decode(0, 0, 0, 0, 0), 7, 0);
     }
 
     private static void asks(String path, int sort, long number) {

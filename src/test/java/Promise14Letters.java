@@ -17,6 +17,7 @@ public final class Promise14Letters {
         parts();
         remembered();
         limits();
+        wideBodies();
         Check.end();
     }
 
@@ -310,5 +311,34 @@ public final class Promise14Letters {
         Check.due("24 of them were lost", x.net(5), 24);
         c.put(1, "b[5] = true");
         Check.due("4004 bytes", x.invoke(1, 0, 1), Check.FULL);
+    }
+
+    /** A BODY of many records with many fields that are not SET is READ, in all formats. */
+    private static void wideBodies() {
+        StringBuilder z = new StringBuilder("record Z { ");
+        for (int i = 1; i <= 24; i++) {
+            z.append("bool f" + i + " @ " + i + " = true; ");
+        }
+        int[] most = {399, 29, 350};
+        for (int format = 0; format < 3; format++) {
+            c = new Check();
+            x = c.house;
+            c.schema(0, z + "} record Q { many Z a @ 1; } record O { int n @ 1; } service S { call k (Q) O @ 1 { out.n = in.a; } }");
+            x.server(0, 0, format);
+            x.client(0, 0, 0);
+            int n = most[format];
+            c.read(0, 0, "Q {a: [{}" + Check.times(",{}", n - 1) + "]}");
+            Check.due("the call", x.invoke(0, 0, 0), 0);
+            Check.due("all LETTERS have room", x.net(5), 0);
+            int letters = x.net(0);
+            for (int i = 0; i <= letters; i++) {
+                x.deliver(0);
+            }
+            Check.due("ANSWERED in format " + format, x.outcome(0, 0, 0), 1);
+            Check.due("the code", x.outcome(0, 0, 1), 0);
+            x.take(0, 0, 1);
+            Check.due("how many items", c.ask(1, 0, "n"), 1);
+            Check.due("all", x.number(), n);
+        }
     }
 }
