@@ -1040,6 +1040,12 @@ class Rooms(Limits):
                     i += 1
             return 'record %s { %s }' % (name, ' '.join(parts))
         t = 'enum E { A = 3; B = -4; } record N { } '
+        if r.random() < 0.3:
+            nums = r.sample(range(1, 18), 15)
+            maps = ' '.join('map<%s, %s> m%d @ %d;' % (r.choice(KINDW[1:10]), r.choice(['bool', 'text', 'N', 'E', 'int']), n, n) for n in nums[:r.choice([5, 10, 13])])
+            t += 'record W { %s } record V { one o { W a @ 1; W b @ 2; %s } %s } record Q { one o { W a @ 1; V b @ 2; W c @ 3; } map<int, W> d @ 4; maybe bool e @ 5; }' % (maps, number('c', 3, True), r.choice(['', 'many bool g @ 9;']))
+            t += ' service S { cell a; ' + ' '.join('call c%d (%s) N @ %d { a = a + 1; }' % (i, x, i) for i, x in enumerate('WVQ')) + ' }'
+            return t
         t += record('W', 1.0, 24) + ' ' + record('V', 0.6, r.randint(10, 24)) + ' ' + record('Q', 0.2, r.randint(5, 24))
         t += ' service S { cell a; ' + ' '.join('call c%d (%s) N @ %d { a = a + 1; }' % (i, x, i) for i, x in enumerate('WVQ')) + ' }'
         return t
@@ -1172,34 +1178,48 @@ class Rooms(Limits):
         words[0] = rp(0, top)
         return b''.join(struct.pack('<Q', x & (1 << 64) - 1) for x in words)
 
+    def shortest(s, S, k):
+        """The shortest bytes of a record that have something of many of its fields."""
+        r = s.r
+        b = b''
+        for f in S.types[k].fields:
+            if (not isnum(f.kind) or f.mode in 'NP') and r.random() < 0.9:
+                b += varint(f.num.v * 8 + 2) + b'\0'
+        return b
+
+    def piece(s, S, f):
+        """A KEY and a value of a field in few bytes."""
+        r = s.r
+        if isnum(f.kind) and f.mode in 'SM':
+            w = WIRE[f.kind]
+            v = varint(r.choice([0, 1, 3, 7, 100])) if w == 0 else struct.pack('<q', r.choice([0, 1, 7]))[:8 if w == 1 else 4]
+            return varint(f.num.v * 8 + w) + v
+        x = b''
+        if f.mode == 'P' and f.kind == 12 and r.random() < 0.5:
+            x = s.shortest(S, f.t)
+            x = b'\x12' + varint(len(x)) + x
+        elif f.mode == 'P' and not isnum(f.kind):
+            x = r.choice([b'', b'\x12\0'])
+        elif f.kind == 12 and f.mode != 'P':
+            x = s.shortest(S, f.t)
+        elif not isnum(f.kind):
+            x = r.choice([b'', b'abc', b'xy', b'z'])
+        return varint(f.num.v * 8 + 2) + varint(len(x)) + x
+
     def wasteful(s, S, k):
         """A STREAM that tells one thing after another again."""
         r = s.r
-        T = S.types[k]
+        some = [s.piece(S, f) for f in S.types[k].fields if f.mode != 'N' or r.random() < 0.1]
+        r.shuffle(some)
+        some = some[:r.choice([1, 2, 3, 20])] or [b'']
         b = b''
-        top = r.choice([100, 1000, 3900])
-        while len(b) < top:
-            f = r.choice(T.fields)
-            n = r.choice([1, 1, 30])
-            if isnum(f.kind) and f.mode in 'SM':
-                w = WIRE[f.kind]
-                one = varint(f.num.v * 8 + w) + (varint(r.choice([0, 1, 3, 7, 100])) if w == 0 else struct.pack('<q', r.choice([0, 1, 7]))[:8 if w == 1 else 4])
-            elif isnum(f.kind) and f.mode == 'N':
-                one = varint(f.num.v * 8 + 2) + varint(0 if r.random() < 0.9 else 8) + (b'' if r.random() < 0.9 else bytes(8))
-                one = varint(f.num.v * 8 + 2) + b'\0'
-            elif f.mode == 'P':
-                one = varint(f.num.v * 8 + 2) + r.choice([b'\0', b'\0', b'\x02\x12\0' if not isnum(f.kind) else b'\0'])
-            elif f.mode == 'N':
-                one = varint(f.num.v * 8 + 2) + b'\0'
-                n = 1
-                if r.random() < 0.9:
-                    continue
-            elif f.kind == 12:
-                one = varint(f.num.v * 8 + 2) + b'\0'
-            else:
-                one = varint(f.num.v * 8 + 2) + r.choice([b'\0', b'\3abc', b'\2xy', b'\1z'])
-            b += one * n
-        return b[:4000]
+        top = r.choice([100, 1000, 3960, 3960])
+        for _ in range(4000):
+            x = r.choice(some)
+            if len(b) + len(x) > top:
+                break
+            b += x
+        return b
 
     def play(s, steps):
         r = s.r

@@ -132,7 +132,11 @@ public final class WireHouse {
     private final Slotted slotted;
     private final Judge judging;
     private final Net post;
-    /** Messages that are worked on, and rows that are written, ahead of what they become. */
+    /**
+     * Messages that are worked on, and rows that are written, ahead of what they become. What is
+     * READ makes two nodes for a byte at most (of a STREAM's MAP without key and item), and many
+     * of them may be gone again in the end: only so much room is enough for what is not LARGE.
+     */
     private final Tree work, made = new Tree(MOST_VALUES + 2, ROOM);
     private final Bytes wire, body = new Bytes(4 * ROOM);
     private int latestPlace = NO;
@@ -153,7 +157,7 @@ public final class WireHouse {
         Bytes text = new Bytes(ROOM);
         Bytes bytes = new Bytes(4 * ROOM);
         Schema empty = new Schema();
-        Tree tree = new Tree(6000, 3 * ROOM);
+        Tree tree = new Tree(2 * ROOM + 2 * MOST_VALUES, 3 * ROOM);
         Lexer tokens = new Lexer(text);
         tape = text;
         wire = bytes;

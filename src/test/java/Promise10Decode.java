@@ -427,6 +427,21 @@ public final class Promise10Decode {
         c.schema(0, "record Q { one o { bool a @ 1; int b @ 2; text t @ 3; Q q @ 4; } text s @ 5 = \"abc\"; map<int, Q> m @ 6; many bool l @ 7; }");
         c.load(0, Check.times("0801 1002 1a0178 2200", 363) + "0800 2a03616263");
         Check.due("the last of a one", c.house.decode(0, 0, 0, 0, 0), 1);
+        StringBuilder maps = new StringBuilder();
+        StringBuilder records = new StringBuilder("record Q { ");
+        for (int i = 1; i <= 15; i++) {
+            records.append("map<int, bool> m" + i + " @ " + i + "; ");
+            maps.append(String.format("%02x00", i * 8 + 2));
+        }
+        Check d = new Check();
+        d.schema(0, records + "} record R { one o { Q a @ 1; Q b @ 2; bool c @ 3; } map<int, Q> m @ 4; }");
+        String fifteen = "1e" + maps;
+        d.load(0, Check.times("0a" + fifteen + "12" + fifteen, 62));
+        Check.due("MAPS of a one's records that went", d.house.decode(0, 1, 0, 0, 0), 46);
+        d.load(0, Check.times("0a" + fifteen + "1800", 117));
+        Check.due("all of them went", d.house.decode(0, 1, 0, 0, 0), 1);
+        d.load(0, Check.times("222012" + fifteen, 117));
+        Check.due("MAPS in a MAP's item that another one took the place of", d.house.decode(0, 1, 0, 0, 0), 48);
         c.load(0, Check.times("3200", 2000));
         Check.due("2000 times one key", c.house.decode(0, 0, 0, 0, 0), 3);
         c.load(0, Check.times("3204 1202 2200", 600) + Check.times("2a03616263", 80));
