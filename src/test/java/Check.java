@@ -95,8 +95,13 @@ final class Check {
     }
 
     String hex(int row) {
+        return hex(row, 0, house.size(row));
+    }
+
+    /** Bytes from .. to - 1 of a row, as pairs of digits. */
+    String hex(int row, int from, int to) {
         StringBuilder hex = new StringBuilder();
-        for (int i = 0; i < house.size(row); i++) {
+        for (int i = from; i < to; i++) {
             hex.append(String.format("%02x", house.octet(row, i)));
         }
         return hex.toString();
