@@ -109,7 +109,8 @@ final class Check {
 
     String text(int row) {
         StringBuilder text = new StringBuilder();
-        for (int i = 0; i < house.size(row); i++) {
+        int n = house.size(row);
+        for (int i = 0; i < n; i++) {
             text.append((char) house.octet(row, i));
         }
         return text.toString();
@@ -118,6 +119,38 @@ final class Check {
     String printed(int m) {
         int n = house.print(m, 7);
         return n < 0 ? "print() answered " + n : text(7);
+    }
+
+    /** A message is PRINTED so; with few calls, as a house has 512: by rows 6 and 7, when the tape is empty. */
+    void printed(String what, int m, String text) {
+        if (house.print(m, 7) != text.length()) {
+            due(what, printed(m), text);
+        } else {
+            row(what, 7, text);
+        }
+    }
+
+    /** A row has these bytes. */
+    void row(String what, int row, String text) {
+        if (house.net(4) == 0) {
+            tape(text);
+            house.load(6);
+            if (house.equal(row, 6) == 1) {
+                return;
+            }
+        }
+        due(what, text(row), text);
+    }
+
+    /** A row has these bytes, as pairs of digits. */
+    void bytes(String what, int row, String hex) {
+        if (house.net(4) == 0) {
+            load(6, hex);
+            if (house.equal(row, 6) == 1) {
+                return;
+            }
+        }
+        due(what, hex(row), hex);
     }
 
     static String times(String text, int n) {

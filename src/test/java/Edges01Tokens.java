@@ -204,7 +204,7 @@ public final class Edges01Tokens {
         }
         Check.due("all digits", c.read(0, 0, "R{b:\"\\x01\\x23\\x45\\x67\\x89\\xab\\xcd\\xef\"}"), 1);
         c.house.encode(0, 0, 0);
-        Check.due("are these bytes", c.hex(0), "0a080123456789abcdef");
+        c.bytes("are these bytes", 0, "0a080123456789abcdef");
         c.fault("a 10 in a STRING", c.read(0, 0, "R{b:\"\n\"}"), 1, 4);
         c.fault("the first byte of what is wrong within", c.read(0, 0, "R{b:  \"ab\\q\"}"), 1, 6);
     }

@@ -495,7 +495,7 @@ public final class Edges02Schemas {
         }
         Check.due("its types", d.house.types(2, 0), 2);
         Check.due("its MARK", d.house.mark(2, 0, 1), mark);
-        Check.due("its messages", d.printed(3), "R{x:6}");
+        d.printed("its messages", 3, "R{x:6}");
         Check.due("its server and LETTERS", d.house.net(0), 1);
         Check.due("its clients", d.house.outcome(1, 0, 0), 0);
         Check.due("schemas of other numbers are none still", d.house.types(1, 0), Check.NO);

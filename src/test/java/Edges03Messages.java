@@ -36,14 +36,23 @@ public final class Edges03Messages {
         c.read(0, 0, "R{i:77}");
     }
 
+    /** Long texts have a house of their own, which has 512 calls. */
+    private static void renewed(String text) {
+        if (text.length() > 400) {
+            begin();
+        }
+    }
+
     private static void wrong(int fault, String marked) {
+        renewed(marked);
         c.fault(marked, c.read(0, 0, marked.replace("^", "")), fault, marked.indexOf('^'));
     }
 
     private static void good(String text, int values, String due) {
+        renewed(text);
         Check.due(text, c.read(0, 1, text), values);
         Check.due("VALUES of " + text, c.house.told(1, 2), values);
-        Check.due(text, c.printed(1), due);
+        c.printed(text, 1, due);
     }
 
     private static void noMessage() {
@@ -446,7 +455,7 @@ public final class Edges03Messages {
         int[] faults = {1, 2, 3, 4, 5, 2, 7};
         for (int i = 0; i < wrong.length; i++) {
             Check.due(wrong[i], c.read(0, 0, wrong[i]), -10 - faults[i]);
-            Check.due("m stays", c.printed(0), "R{i:77,t:\"x\"}");
+            c.printed("m stays", 0, "R{i:77,t:\"x\"}");
             Check.due("a fault makes no message", c.read(0, 5, wrong[i]), -10 - faults[i]);
             Check.due("there is none", c.house.told(5, 0), Check.NO);
         }
@@ -456,7 +465,7 @@ public final class Edges03Messages {
         begin();
         c.load(0, "38ffffffffffffffffff01 49ffffffffffffffff 3080808080808080808001 40ffffffffffffffffff01");
         Check.due("decode", c.house.decode(0, 2, 0, 0, 1), 4);
-        Check.due("without sign", c.printed(1), "R{j:-9223372036854775808,w:18446744073709551615,y:-9223372036854775808,g:18446744073709551615}");
+        c.printed("without sign", 1, "R{j:-9223372036854775808,w:18446744073709551615,y:-9223372036854775808,g:18446744073709551615}");
         c.tape(c.printed(1));
         c.fault("with which a text is not read again", c.house.read(0, 2), 1, 5);
         StringBuilder items = new StringBuilder("\"");
@@ -465,7 +474,7 @@ public final class Edges03Messages {
         }
         c.read(0, 1, "R{s:" + items + "\"}");
         String due = "\\x00\\x09\\x0a\\x1f !\\\"#[\\\\]~\\x7f\\x80\\xfe\\xff";
-        Check.due("ITEMS of STRINGS", c.printed(1), "R{s:\"" + due + due + due + due.substring(0, due.indexOf("\\x7f")) + "\"}");
+        c.printed("ITEMS of STRINGS", 1, "R{s:\"" + due + due + due + due.substring(0, due.indexOf("\\x7f")) + "\"}");
         good("R{e:C,i:-2147483648}", 2, "R{i:-2147483648,e:C}");
         good("R{mr:<-1:{e:A}>,lr:[{},{e:-1}]}", 8, "R{lr:[{},{e:-1}],mr:<-1:{e:A}>}");
         good("R{on:{},b:true}", 2, "R{b:true,on:{}}");

@@ -41,16 +41,24 @@ public final class Edges04Stream {
         c.schema(0, SCHEMA);
     }
 
-    private static void good(int k, String hex, int values, String due) {
+    /** Long rows have a house of their own, which has 512 calls. */
+    private static void load(String hex) {
+        if (hex.length() > 400) {
+            begin();
+        }
         c.load(0, hex);
+    }
+
+    private static void good(int k, String hex, int values, String due) {
+        load(hex);
         Check.due(hex, c.house.decode(0, k, 0, 0, 1), values);
         Check.due("place() of " + hex, c.house.place(), Check.NO);
-        Check.due(hex, c.printed(1), due);
+        c.printed(hex, 1, due);
     }
 
     private static void bad(int k, String marked, int fault) {
         String digits = marked.replace(" ", "");
-        c.load(0, digits);
+        load(digits);
         c.fault(marked, c.house.decode(0, k, 0, 0, 0), fault, digits.indexOf('^') / 2);
     }
 
@@ -59,14 +67,14 @@ public final class Edges04Stream {
         c.load(0, hex);
         Check.due(hex + " is READ", c.house.decode(0, k, 0, 0, 1) >= 0 ? 1 : 0, 1);
         c.house.encode(1, 0, 2);
-        Check.due(hex + " is WRITTEN", c.hex(2), due.replace(" ", ""));
+        c.bytes(hex + " is WRITTEN", 2, due.replace(" ", ""));
     }
 
     private static void wire(String text, String hex) {
         String due = hex.replace(" ", "");
         c.read(0, 1, text);
         Check.due("encode of " + text, c.house.encode(1, 0, 2), due.length() / 2);
-        Check.due(text, c.hex(2), due);
+        c.bytes(text, 2, due);
         Check.due("READ again: " + text, c.house.decode(0, c.house.told(1, 1), 0, 2, 3), c.house.told(1, 2));
         Check.due("the same: " + text, c.house.same(1, 3), 1);
     }
@@ -256,17 +264,25 @@ public final class Edges04Stream {
             "29 0000000000000000", "2a 00", "48 00", "4a 00", "4d 00000000", "50 00", "51 0000000000000000", "55 00000000",
             "58 00", "61 0000000000000000", "62 00", "68 00", "69 0000000000000000", "6d 00000000", "72 00", "78 00",
             "a201 00", "a801 00", "b001 00", "b801 00"};
-        for (String hex : r) {
+        for (int i = 0; i < r.length; i++) {
+            String hex = r[i];
+            if (i % 14 == 0) {
+                begin();
+            }
             good(R, hex, 1, "R{}");
             Check.due("unknown: " + hex, c.house.told(1, 5), 1);
             c.house.encode(1, 0, 2);
-            Check.due("as it came", c.hex(2), hex.replace(" ", ""));
+            c.bytes("as it came", 2, hex.replace(" ", ""));
         }
         begin();
         String[] l = {"09 0000000000000000", "0d 00000000", "11 0000000000000000", "15 00000000", "20 00", "21 0000000000000000",
             "28 00", "2d 00000000", "31 0000000000000000", "35 00000000", "38 00", "39 0000000000000000", "3d 00000000", "40 00", "48 00",
             "49 0000000000000000", "4d 00000000", "58 00", "59 0000000000000000", "5d 00000000", "60 00", "800100", "850100000000"};
-        for (String hex : l) {
+        for (int i = 0; i < l.length; i++) {
+            String hex = l[i];
+            if (i == 12) {
+                begin();
+            }
             good(L, hex, 1, "L{}");
             Check.due("unknown: " + hex, c.house.told(1, 5), 1);
         }
@@ -626,13 +642,13 @@ public final class Edges04Stream {
         for (int m : new int[] {0, 5}) {
             c.fault("a fault", c.house.decode(0, R, 0, 0, m), 3, 0);
         }
-        Check.due("m stays", c.printed(0), "R{i:77}");
+        c.printed("m stays", 0, "R{i:77}");
         Check.due("a fault makes no message", c.house.told(5, 0), Check.NO);
-        Check.due("the row stays", c.hex(0), "00");
+        c.bytes("the row stays", 0, "00");
         c.load(0, "1005");
         Check.due("an enum", c.house.decode(0, 0, 0, 0, 0), Check.BAD);
         Check.due("an empty record", c.house.decode(0, 1, 0, 0, 0), 1);
         Check.due("the same row in place of m", c.house.decode(0, R, 0, 0, 0), 1);
-        Check.due("it is R now", c.printed(0), "R{i:5}");
+        c.printed("it is R now", 0, "R{i:5}");
     }
 }

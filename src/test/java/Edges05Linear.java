@@ -56,7 +56,7 @@ public final class Edges05Linear {
         load(hex);
         Check.due(hex, c.house.decode(0, R, 1, 0, 1), values);
         Check.due("place() of " + hex, c.house.place(), Check.NO);
-        Check.due(hex, c.printed(1), due);
+        c.printed(hex, 1, due);
         Check.due(hex + " again", c.house.encode(1, 1, 2), c.house.size(0));
         Check.due(hex + " is WRITTEN so", c.house.equal(0, 2), 1);
     }
@@ -469,7 +469,7 @@ public final class Edges05Linear {
         c.load(0, "0805 f80c01 1205 f80c02 0806");
         Check.due("with unknown fields", c.house.decode(0, R, 0, 0, 0), 5);
         Check.due("LINEAR", c.house.encode(0, 1, 1), 16);
-        Check.due("without them", c.hex(1), "00000005 00000001 00000006 00000000".replace(" ", ""));
+        c.bytes("without them", 1, "00000005 00000001 00000006 00000000".replace(" ", ""));
         begin("");
         c.load(0, "f80c01");
         c.house.decode(0, R, 0, 0, 0);
@@ -483,7 +483,7 @@ public final class Edges05Linear {
             c.read(0, 0, "R{" + v + "}");
             Check.due("not WRITTEN: " + v, c.house.encode(0, 1, 3), Check.NO);
         }
-        Check.due("the row stays", c.text(3), "a");
+        c.row("the row stays", 3, "a");
         c.read(0, 0, "R{a:C,b:D,l:[A,B,C,D],m:<0:A>,p:B,r:{a:B}}");
         Check.due("all have a constant", c.house.encode(0, 1, 3) > 0 ? 1 : 0, 1);
         // NO ahead of FULL, wherever it stands
@@ -534,8 +534,8 @@ public final class Edges05Linear {
         for (int m : new int[] {0, 5}) {
             c.fault("a fault", c.house.decode(0, R, 1, 0, m), 2, 0);
         }
-        Check.due("m stays", c.printed(0), "R{i:77}");
+        c.printed("m stays", 0, "R{i:77}");
         Check.due("a fault makes no message", c.house.told(5, 0), Check.NO);
-        Check.due("the row stays", c.hex(0), "0000000200000000");
+        c.bytes("the row stays", 0, "0000000200000000");
     }
 }

@@ -194,7 +194,7 @@ public final class Edges06Layouts {
     private static void wire(String text, long... words) {
         c.read(0, 0, text);
         Check.due("encode of " + text, c.house.encode(0, 2, 3), words.length * 8);
-        Check.due(text, c.hex(3), row(words));
+        c.bytes(text, 3, row(words));
         Check.due("decode of " + text, c.house.decode(0, c.house.told(0, 1), 2, 3, 1), c.house.told(0, 2));
         Check.due("the same again: " + text, c.house.same(0, 1), 1);
     }

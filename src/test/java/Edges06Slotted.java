@@ -57,7 +57,7 @@ public final class Edges06Slotted {
         c.load(0, Edges06Layouts.row(words));
         Check.due(due, c.house.decode(0, 2, 2, 0, 1), values);
         Check.due("place() of " + due, c.house.place(), Check.NO);
-        Check.due("it", c.printed(1), due);
+        c.printed("it", 1, due);
     }
 
     /** The fault is told at the first byte of a word. */
@@ -759,8 +759,8 @@ public final class Edges06Slotted {
         for (int m : new int[] {0, 5}) {
             c.fault("a fault", c.house.decode(0, 2, 2, 0, m), 2, 0);
         }
-        Check.due("m stays", c.printed(0), "R{i:77}");
+        c.printed("m stays", 0, "R{i:77}");
         Check.due("a fault makes no message", c.house.told(5, 0), Check.NO);
-        Check.due("the row stays", c.hex(0), Check.word(2));
+        c.bytes("the row stays", 0, Check.word(2));
     }
 }

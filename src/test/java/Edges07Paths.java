@@ -51,16 +51,16 @@ public final class Edges07Paths {
 
     /** The path of ask() and remove() has a fault. */
     private static void wrong(int fault, String marked) {
-        String before = c.printed(0);
+        c.house.copy(0, 11);
         c.fault("ask " + marked, c.ask(0, 0, marked.replace("^", "")), fault, marked.indexOf('^'));
         c.fault("remove " + marked, c.remove(0, marked.replace("^", "")), fault, marked.indexOf('^'));
-        Check.due("m stays", c.printed(0), before);
+        Check.due("m stays", c.house.same(0, 11), 1);
     }
 
     private static void wrongPut(int fault, String marked) {
-        String before = c.printed(0);
+        c.house.copy(0, 11);
         c.fault("put " + marked, c.put(0, marked.replace("^", "")), fault, marked.indexOf('^'));
-        Check.due("m stays", c.printed(0), before);
+        Check.due("m stays", c.house.same(0, 11), 1);
         Check.due("the tape is empty", c.house.net(4), 0);
     }
 
@@ -74,15 +74,15 @@ public final class Edges07Paths {
         Check.due(text, c.put(0, text), values);
         Check.due("no fault of " + text, c.house.place(), Check.NO);
         Check.due("VALUES of " + text, c.house.told(0, 2), values);
-        Check.due("printed behind " + text, c.printed(0), due);
+        c.printed("printed behind " + text, 0, due);
     }
 
     private static void nothing(String text) {
         c.ask(0, 0, "i.");
-        String before = c.printed(0);
+        c.house.copy(0, 11);
         Check.due(text, c.put(0, text), Check.NO);
         Check.due("NO leaves the place", c.house.place(), 1);
-        Check.due("m stays", c.printed(0), before);
+        Check.due("m stays", c.house.same(0, 11), 1);
         Check.due("the tape is empty", c.house.net(4), 0);
     }
 
@@ -217,7 +217,7 @@ public final class Edges07Paths {
 
     private static void bytes(String path, String due) {
         asks(path, 2, due.length());
-        Check.due("bytes of " + path, c.text(5), due);
+        c.row("bytes of " + path, 5, due);
     }
 
     private static void sorts() {
@@ -263,7 +263,7 @@ public final class Edges07Paths {
         for (String path : "r mi mt mr oi ot or on r.i r.t r.l r.m r.r mr.l or.i or.m lr[1] lr[-1] lr[1].i lr[1].l m[0] m[0].i m[0].l mt2[\"\"] mx[1] lr[0].r lr[0].r.l l[1] lt[0] r.l[0] r.m[0]".split(" ")) {
             c.load(5, "41");
             asks(path, 0, 0);
-            Check.due("the row stays", c.text(5), "A");
+            c.row("the row stays", 5, "A");
         }
         asks("l", 4, 1);
         asks("lt", 4, 0);
@@ -303,12 +303,12 @@ public final class Edges07Paths {
         c.load(5, "4142");
         for (String path : "i l lt m r mi".split(" ")) {
             c.ask(0, 5, path);
-            Check.due("the row stays with " + path, c.text(5), "AB");
+            c.row("the row stays with " + path, 5, "AB");
         }
         c.ask(0, 5, "x");
-        Check.due("with a fault, too", c.text(5), "AB");
+        c.row("with a fault, too", 5, "AB");
         c.ask(0, 5, "t");
-        Check.due("bytes", c.text(5), "xyz");
+        c.row("bytes", 5, "xyz");
         c.ask(0, 5, "s");
         Check.due("no bytes", c.house.size(5), 0);
         c.load(5, "5a" + Check.times("41", 100));
@@ -613,7 +613,7 @@ public final class Edges07Paths {
     private static void take(String path, int values, String due) {
         Check.due("remove " + path, c.remove(0, path), values);
         Check.due("no fault of " + path, c.house.place(), Check.NO);
-        Check.due("behind " + path, c.printed(0), due);
+        c.printed("behind " + path, 0, due);
     }
 
     private static void takenAway() {
@@ -625,7 +625,7 @@ public final class Edges07Paths {
         take("i", 23, "R{t:\"x\",e:A," + rest);
         take("t", 22, "R{e:A," + rest);
         Check.due("its DEFAULT", c.ask(0, 5, "t"), 2);
-        Check.due("d", c.text(5), "d");
+        c.row("d", 5, "d");
         take("e", 21, "R{" + rest);
         take("r.l[0]", 20, "R{" + rest.replace("[7,8,9]", "[8,9]"));
         take("r.l[1]", 19, "R{" + rest.replace("[7,8,9]", "[8]"));
@@ -651,7 +651,7 @@ public final class Edges07Paths {
         for (String path : "r mi mt mr oi ot or on r.i r.l lr[1] lr[-1] lr[0].r.i l[0] m[0] m[0].i mt2[\"\"] lt[0]".split(" ")) {
             Check.due("remove " + path, c.remove(0, path), Check.NO);
             Check.due("NO leaves the place", c.house.place(), 1);
-            Check.due("m stays", c.printed(0), "R{i:1,lr:[{}]}");
+            c.printed("m stays", 0, "R{i:1,lr:[{}]}");
             Check.due("the tape is empty", c.house.net(4), 0);
         }
         // MANY and MAPS are there with no items, too, and a SINGLE number, text
@@ -668,7 +668,7 @@ public final class Edges07Paths {
         for (String path : new String[] {"", "x", "l[", "i.i", "l[0] 1", "m[2147483648]"}) {
             c.remove(0, path);
             Check.due("the tape is empty", c.house.net(4), 0);
-            Check.due("m stays", c.printed(0), "R{i:1,l:[1]}");
+            c.printed("m stays", 0, "R{i:1,l:[1]}");
         }
     }
 
@@ -677,8 +677,8 @@ public final class Edges07Paths {
         c.read(0, 1, two);
         Check.due("merge " + one + " " + two, c.house.merge(0, 1), values);
         Check.due("VALUES", c.house.told(0, 2), values);
-        Check.due("MERGED " + one + " " + two, c.printed(0), due);
-        Check.due("n stays", c.printed(1), two);
+        c.printed("MERGED " + one + " " + two, 0, due);
+        c.printed("n stays", 1, two);
     }
 
     private static void merged() {
@@ -700,12 +700,12 @@ public final class Edges07Paths {
         merge("R{mt2:<\"b\":1>}", "R{mt2:<\"a\":2,\"b\":0>}", 5, "R{mt2:<\"a\":2,\"b\":0>}");
         c.read(0, 0, "R{i:1,l:[1],lr:[{}],m:<1:{}>,r:{l:[2]},oi:5}");
         Check.due("with itself", c.house.merge(0, 0), 15);
-        Check.due("its bytes of before", c.printed(0), "R{i:1,r:{l:[2,2]},l:[1,1],lr:[{},{}],m:<1:{}>,oi:5}");
+        c.printed("its bytes of before", 0, "R{i:1,r:{l:[2,2]},l:[1,1],lr:[{},{}],m:<1:{}>,oi:5}");
         c.load(0, "f80c01 4203f80c02");
         c.house.decode(0, R, 0, 0, 0);
         Check.due("unknown ones with themselves", c.house.merge(0, 0), 5);
         c.house.encode(0, 0, 1);
-        Check.due("behind those of before", c.hex(1), "4206f80c02f80c02f80c01f80c01");
+        c.bytes("behind those of before", 1, "4206f80c02f80c02f80c01f80c01");
     }
 
     private static void mergedOnes() {
@@ -757,7 +757,7 @@ public final class Edges07Paths {
             Check.due("merge is NO", c.house.merge(b[0], b[1]), Check.NO);
             Check.due("differ is NO", c.house.differ(b[0], b[1]), Check.NO);
         }
-        Check.due("m stays", c.printed(0), "R{i:1}");
+        c.printed("m stays", 0, "R{i:1}");
         Check.due("of two records", c.house.same(0, 1), 0);
         Check.due("of two schemas", c.house.same(0, 2), 0);
         Check.due("one is none", c.house.same(0, 5), Check.NO);
@@ -830,16 +830,16 @@ public final class Edges07Paths {
         for (int[] b : new int[][] {{-1, 3}, {2, 3}, {0, -1}, {0, 8}, {2, 8}, {Integer.MAX_VALUE, 3}, {Integer.MIN_VALUE, 3}}) {
             Check.due("BAD", c.house.path(b[0], b[1]), Check.BAD);
         }
-        Check.due("the row stays", c.text(3), "A");
+        c.row("the row stays", 3, "A");
         Check.due("NO keeps them", c.house.differ(0, 9), Check.NO);
         Check.due("BAD keeps them", c.house.differ(0, 12), Check.BAD);
         c.house.drop(0);
         c.house.drop(1);
         Check.due("messages that went", c.house.path(1, 3), 3);
-        Check.due("its path", c.text(3), "r.u");
+        c.row("its path", 3, "r.u");
         c.schema(0, "record Q { int z @ 2; }");
         Check.due("a schema that went", c.house.path(0, 3), 1);
-        Check.due("its path", c.text(3), "i");
+        c.row("its path", 3, "i");
         c.read(0, 0, "Q{}");
         Check.due("none", c.house.differ(0, 0), 0);
         Check.due("none now", c.house.path(0, 3), Check.BAD);

@@ -9,7 +9,7 @@ public final class Promise02Tape {
         Check.due("cut of less than none", x.cut(-1), Check.BAD);
         Check.due("cut of none", x.cut(0), 20);
         Check.due("load", x.load(3), 20);
-        Check.due("row", c.hex(3), "01020304ffffffff000000007fffffff80000000");
+        c.bytes("row", 3, "01020304ffffffff000000007fffffff80000000");
         Check.due("tape is empty then", x.net(4), 0);
 
         x.feed(1, 2, 3, 4, 5);
@@ -18,7 +18,7 @@ public final class Promise02Tape {
         Check.due("load of a row below 0", x.load(-1), Check.BAD);
         Check.due("the tape stays", x.net(4), 3);
         Check.due("load in place of a longer row", x.load(3), 3);
-        Check.due("row", c.hex(3), "000000");
+        c.bytes("row", 3, "000000");
         Check.due("load of an empty tape", x.load(3), 0);
         Check.due("row", x.size(3), 0);
 

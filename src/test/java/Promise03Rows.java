@@ -17,10 +17,10 @@ public final class Promise03Rows {
 
         c.tape("ab");
         Check.due("unload behind the tape", x.unload(0), 6);
-        Check.due("the row keeps its bytes", c.hex(0), "007f80ff");
+        c.bytes("the row keeps its bytes", 0, "007f80ff");
         Check.due("unload once more", x.unload(0), 10);
         x.load(1);
-        Check.due("both", c.hex(1), "6162007f80ff007f80ff");
+        c.bytes("both", 1, "6162007f80ff007f80ff");
         Check.due("unload of no row", x.unload(-1), Check.BAD);
         Check.due("unload of an empty row", x.unload(2), 0);
 

@@ -20,7 +20,7 @@ public final class Promise04AlterEqual {
         Check.due("equal of no row", x.equal(0, 8), Check.BAD);
         Check.due("equal of no row", x.equal(-1, 0), Check.BAD);
         Check.due("alter", x.alter(0, 1, 255), 0x0f);
-        Check.due("altered", c.hex(0), "0f0f");
+        c.bytes("altered", 0, "0f0f");
         Check.due("not equal then", x.equal(0, 1), 0);
         Check.due("alter by none", x.alter(0, 0, 0), 0x0f);
         Check.due("mask above 255", x.alter(0, 0, 256), Check.BAD);
@@ -28,7 +28,7 @@ public final class Promise04AlterEqual {
         Check.due("no such byte", x.alter(0, 2, 1), Check.BAD);
         Check.due("byte below 0", x.alter(0, -1, 1), Check.BAD);
         Check.due("no such row", x.alter(8, 0, 1), Check.BAD);
-        Check.due("nothing changed", c.hex(0), "0f0f");
+        c.bytes("nothing changed", 0, "0f0f");
     }
 
     private static void schemas() {

@@ -151,6 +151,7 @@ public final class Promise05Types {
             {"text", "\"\\xf4\\x90\\x80\\x80\"", "7"}, {"bytes", "A", "7"}, {"E", "B", "5"},
             {"E", "32768", "7"}, {"E", "true", "7"}, {"int", "A", "7"}, {"R", "1", "7"},
             {"many int", "1", "7"}, {"maybe int", "1", "7"}, {"map<int, int>", "1", "7"}};
+        c = new Check();
         for (String[] w : wrong) {
             String text = "enum E { A = 1; } record R { " + w[0] + " x @ 9 = " + w[1] + "; }";
             int at = text.indexOf("@ 9 = ") + 6;

@@ -1,6 +1,6 @@
 /** Promise 7: describe, mark, read. */
 public final class Promise07Describe {
-    private static final Check C = new Check();
+    private static Check C = new Check();
 
     public static void main(String[] args) {
         described();
@@ -17,7 +17,7 @@ public final class Promise07Describe {
         String due = "enum E { A = - 7 ; } record R { text t @ 1 = \"\\x41\\\"\" ; map < int , E > m @ 2 ; } "
             + "service S { cell c ; call k ( R ) R @ 0 { c = - ( 1 + in . m ) ; } }";
         Check.due("describe", x.describe(0, 2), due.length());
-        Check.due("WRITTEN OUT", C.text(2), due);
+        C.row("WRITTEN OUT", 2, due);
         C.tape(due);
         x.schema(1);
         x.describe(1, 3);
@@ -27,6 +27,9 @@ public final class Promise07Describe {
         Check.due("none there", x.describe(2, 0), Check.NO);
         C.schema(2, "");
         Check.due("nothing", x.describe(2, 3), 0);
+        C = new Check();
+        x = C.house;
+        C.load(2, "41");
         // each number but the first is told with two blanks more
         StringBuilder keeps = new StringBuilder("record R{keep 1");
         for (int i = 2; i <= 690; i++) {
@@ -34,7 +37,9 @@ public final class Promise07Describe {
         }
         Check.due("many numbers", C.schema(2, keeps.append(";}").toString()), 1);
         Check.due("no room for " + keeps.length(), x.describe(2, 2), Check.FULL);
-        Check.due("the row stays", C.text(2), due);
+        C.row("the row stays", 2, "A");
+        C = new Check();
+        x = C.house;
         StringBuilder exactly = new StringBuilder("record R{keep 1");
         for (int i = 2; i <= 680; i++) {
             exactly.append(',').append(i);
@@ -57,6 +62,7 @@ public final class Promise07Describe {
     }
 
     private static void marks() {
+        C = new Check();
         WireHouse x = C.house;
         C.schema(0, "record A { B b @ 1; C c @ 2; } record B { D d @ 1; A a @ 2; } record C { many E e @ 1; } record D { } enum E { X = 1; } service S { call k (C) D @ 1 { } }");
         String a = "record A { B b @ 1 ; C c @ 2 ; } ";
@@ -84,6 +90,7 @@ public final class Promise07Describe {
     }
 
     private static void messages() {
+        C = new Check();
         C.schema(0, SCHEMA);
         values("{}", 0, 0);
         values("{b: false, i: 5, t: \"d\", e: A, li: [], mt: <>}", 0, 0);
@@ -109,6 +116,7 @@ public final class Promise07Describe {
     }
 
     private static void faults() {
+        C = new Check();
         C.schema(0, SCHEMA);
         C.read(0, 0, "R {i: 77}");
         wrong("", 2, 0);
@@ -158,20 +166,25 @@ public final class Promise07Describe {
         wrong("R {mt: <1 \"\">}", 2, 10);
         wrong("R {mr: <\"\\xff\": {}>}", 7, 8);
         wrong("R {mr: <\"a\": {}, \"\\x61\": {}>}", 4, 17);
-        Check.due("a fault leaves the message", C.printed(0), "R{i:77}");
+        C.printed("a fault leaves the message", 0, "R{i:77}");
     }
 
     private static void limits() {
+        C = new Check();
         C.schema(0, SCHEMA);
         String twelve = Check.times("{r:", 11) + "{" + Check.times("}", 12);
         Check.due("12 deep", C.read(0, 0, "R " + twelve), 11);
         wrong("R {r:" + twelve + "}", 3, 2 + 12 * 3);
         wrong("R {lr:[" + twelve + "]}", 3, 2 + 5 + 11 * 3);
+        C = new Check();
+        C.schema(0, SCHEMA);
         String many = Check.times("0,", 398) + "0";
         Check.due("400 VALUES", C.read(0, 0, "R {li: [" + many + "]}"), 400);
         wrong("R {li: [0," + many + "]}", 3, 0);
         wrong("R {li: [0," + many + "]} }", 2, 2 + 6 + 2 + 797 + 3);
         Check.due("DEFAULTS do not count", C.read(0, 0, "R {li: [" + many + "], i: 5}"), 400);
+        C = new Check();
+        C.schema(0, SCHEMA);
         String sixty = "\"" + Check.times("x", 60) + "\",";
         String bytes = Check.times(sixty, 33) + "\"" + Check.times("y", 20) + "\"";
         Check.due("2000 BYTES", C.read(0, 0, "R {ly: [" + bytes + "]}"), 35);

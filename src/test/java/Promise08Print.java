@@ -4,7 +4,7 @@ public final class Promise08Print {
 
     private static void prints(String text, String due) {
         C.read(0, 0, text);
-        Check.due(text, C.printed(0), due);
+        C.printed(text, 0, due);
     }
 
     public static void main(String[] args) {
@@ -21,7 +21,7 @@ public final class Promise08Print {
         // what no text tells: the highest ulong, the lowest long
         C.load(0, "28 ffffffffffffffffff01 8001 80808080808080808001 6a 0d 08 ffffffffffffffffff01 10 01");
         Check.due("decode", x.decode(0, 1, 0, 0, 1), 5);
-        Check.due("the highest", C.printed(1), "R{w:18446744073709551615,m:<18446744073709551615:A>,j:-9223372036854775808}");
+        C.printed("the highest", 1, "R{w:18446744073709551615,m:<18446744073709551615:A>,j:-9223372036854775808}");
 
         Check.due("told: schema", x.told(1, 0), 0);
         Check.due("record", x.told(1, 1), 1);
@@ -40,7 +40,7 @@ public final class Promise08Print {
         Check.due("unknown fields are VALUES", x.decode(0, 1, 0, 0, 2), 4);
         Check.due("BYTES of unknown fields", x.told(2, 3), 1 + 3 + 4);
         Check.due("unknown fields", x.told(2, 5), 3);
-        Check.due("are left out", C.printed(2), "R{q:{}}");
+        C.printed("are left out", 2, "R{q:{}}");
 
         Check.due("copy", x.copy(2, 3), 1);
         Check.due("the same", x.same(2, 3), 1);
@@ -49,7 +49,7 @@ public final class Promise08Print {
         Check.due("copy to itself", x.copy(2, 2), 1);
         Check.due("copy of none", x.copy(5, 2), Check.NO);
         Check.due("to no such", x.copy(5, 12), Check.BAD);
-        Check.due("it stays", C.printed(2), "R{i:1,q:{}}");
+        C.printed("it stays", 2, "R{i:1,q:{}}");
 
         Check.due("print of none", x.print(5, 0), Check.NO);
         Check.due("print to no row", x.print(5, 8), Check.BAD);
@@ -64,7 +64,7 @@ public final class Promise08Print {
         C.put(0, "abcdefghij_names[188] = " + longNumber);
         C.load(0, "aa");
         Check.due("print of more than 4000", x.print(0, 0), Check.FULL);
-        Check.due("the row stays", C.hex(0), "aa");
+        C.bytes("the row stays", 0, "aa");
         Check.end();
     }
 }

@@ -1,6 +1,6 @@
 /** Promise 9: drop, same, encode; the bytes of the three formats. */
 public final class Promise09Encode {
-    private static final Check C = new Check();
+    private static Check C = new Check();
     private static final String SCHEMA = "enum E { A = 1; B = -2; } record N { } record P { int x @ 1; } record R { bool b @ 1; int i @ 2 = 5; uint u @ 3; zint z @ 4; fix f @ 5; long j @ 6; ulong w @ 7; zlong y @ 8; fixlong g @ 9; text t @ 10 = \"d\"; bytes s @ 11; E e @ 12; }";
 
     public static void main(String[] args) {
@@ -55,12 +55,13 @@ public final class Promise09Encode {
         String due = hex.replace(" ", "");
         C.read(0, 0, text);
         Check.due("encode of " + text, C.house.encode(0, format, 3), due.length() / 2);
-        Check.due(text, C.hex(3), due);
+        C.bytes(text, 3, due);
         Check.due("decode of " + text, C.house.decode(0, C.house.told(0, 1), format, 3, 1), C.house.told(0, 2));
         Check.due("the same again", C.house.same(0, 1), 1);
     }
 
     private static void stream() {
+        C = new Check();
         C.schema(0, SCHEMA);
         wire(0, "R {}", "");
         wire(0, "R {b: true, i: -1, u: 300, z: -1}", "0801 10ffffffffffffffffff01 18ac02 2001");
@@ -75,7 +76,7 @@ public final class Promise09Encode {
         C.load(0, "f80101 fa01020102 1a0105");
         Check.due("decode", C.house.decode(0, 2, 0, 0, 0), 4);
         C.house.encode(0, 0, 1);
-        Check.due("unknown fields", C.hex(1), "1a0105f80101fa01020102");
+        C.bytes("unknown fields", 1, "1a0105f80101fa01020102");
         Check.due("no such message", C.house.encode(12, 0, 0), Check.BAD);
         Check.due("no such format", C.house.encode(0, 3, 0), Check.BAD);
         Check.due("no such row", C.house.encode(0, 0, -1), Check.BAD);
@@ -83,6 +84,7 @@ public final class Promise09Encode {
     }
 
     private static void linear() {
+        C = new Check();
         C.schema(0, SCHEMA);
         wire(1, "R {i: -1, z: -2, f: 1, w: 1, t: \"abcde\", s: \"\\x01\", e: B}",
             "00000000 ffffffff 00000000 fffffffe 00000001 0000000000000000 0000000000000001 0000000000000000 0000000000000000 00000005 6162636465000000 00000001 01000000 fffffffe");
@@ -106,6 +108,7 @@ public final class Promise09Encode {
         C.schema(0, "enum E { A = 1; } record R { E e @ 1 = 9; }");
         C.read(0, 0, "R {}");
         Check.due("a DEFAULT that no constant has", C.house.encode(0, 1, 0), Check.NO);
+        C = new Check();
         C.schema(0, "record R { many long l @ 1; }");
         C.read(0, 0, "R {l: [0" + Check.times(",0", 398) + "]}");
         Check.due("much", C.house.encode(0, 1, 0), 4 + 399 * 8);
@@ -121,6 +124,7 @@ public final class Promise09Encode {
     }
 
     private static void slotted() {
+        C = new Check();
         C.schema(0, "enum E { A = 1; } record N { } record P { int x @ 1; text t @ 2 = \"d\"; } record R { bool b @ 1 = true; int i @ 2 = 5; E e @ 3; maybe long j @ 4; P p @ 5; many bool l @ 6; many P q @ 7; map<int, text> m @ 8; one o { zint a @ 9; bytes c @ 10; N n @ 11; } many text k @ 12; }");
         wire(2, "N {}", Check.word(0xfffffffcL) );
         // R: b 0, i 32, e 16, j FLAG 1, j 64, TAG 128, its 64 at 192: D 4; p l q m o k: P 6

@@ -1,11 +1,10 @@
 /** Promise 10: decode with the faults of three formats, ask, number. */
 public final class Promise10Decode {
-    private static final Check C = new Check();
+    private static Check C = new Check();
     private static final String SCHEMA = "enum E { A = 1; B = 7; } record N { } record R { bool b @ 1 = true; int i @ 2; text t @ 3 = \"d\"; R r @ 4; many int l @ 5; many text lt @ 6; many R lr @ 7; map<text, R> m @ 8; map<int, E> me @ 9; one o { text p @ 10; N n @ 11; long j @ 12; R q @ 13; } maybe bytes y @ 14; E e @ 15; }";
     private static final int R = 2;
 
     public static void main(String[] args) {
-        C.schema(0, SCHEMA);
         arguments();
         streamValues();
         streamFaults();
@@ -25,6 +24,8 @@ public final class Promise10Decode {
     }
 
     private static void arguments() {
+        C = new Check();
+        C.schema(0, SCHEMA);
         WireHouse x = C.house;
         C.load(0, "");
         Check.due("an empty row", x.decode(0, R, 0, 0, 0), 0);
@@ -41,17 +42,19 @@ public final class Promise10Decode {
     private static void good(int format, String hex, String due) {
         C.load(0, hex);
         Check.due("decode of " + hex + " is told at", C.house.decode(0, R, format, 0, 0) >= 0 ? C.house.place() : 0, Check.NO);
-        Check.due(hex, C.printed(0), due);
+        C.printed(hex, 0, due);
     }
 
     private static void bad(int format, String hex, int fault, int place) {
         C.load(0, hex);
         C.read(0, 0, "R {i: 77}");
         C.fault(hex, C.house.decode(0, R, format, 0, 0), fault, place);
-        Check.due("the message stays", C.printed(0), "R{i:77}");
+        C.printed("the message stays", 0, "R{i:77}");
     }
 
     private static void streamValues() {
+        C = new Check();
+        C.schema(0, SCHEMA);
         good(0, "0800", "R{b:false}");
         good(0, "0880808080808080808001", "R{}");
         good(0, "10ffffffff0f 7887800c", "R{i:-1,e:B}");
@@ -73,10 +76,12 @@ public final class Promise10Decode {
         C.load(0, "1201 ff 2001 800105 f8ffffff0f00");
         Check.due("unknown: another WIRE, another number", C.house.decode(0, R, 0, 0, 0), 4);
         C.house.encode(0, 0, 1);
-        Check.due("as they stand", C.hex(1), "1201ff2001800105f8ffffff0f00");
+        C.bytes("as they stand", 1, "1201ff2001800105f8ffffff0f00");
     }
 
     private static void streamFaults() {
+        C = new Check();
+        C.schema(0, SCHEMA);
         bad(0, "08", 1, 1);
         bad(0, "0880", 1, 2);
         bad(0, "80", 1, 1);
@@ -100,6 +105,8 @@ public final class Promise10Decode {
         bad(0, "3203 eda080", 5, 2);
         bad(0, "4204 0a02 c328", 5, 4);
         bad(0, "4a02 0b00", 4, 2);
+        C = new Check();
+        C.schema(0, SCHEMA);
         String deep = nested("", 11);
         C.load(0, deep);
         Check.due("12 deep", C.house.decode(0, R, 0, 0, 1), 11);
@@ -112,6 +119,8 @@ public final class Promise10Decode {
         bad(0, "2a9103" + Check.times("01", 401), 7, 0);
         C.load(0, "2a8f03" + Check.times("01", 399));
         Check.due("400 VALUES", C.house.decode(0, R, 0, 0, 1), 400);
+        C = new Check();
+        C.schema(0, SCHEMA);
         C.load(0, Check.times("1001", 1000));
         Check.due("one value, told often", C.house.decode(0, R, 0, 0, 1), 1);
     }
@@ -126,6 +135,8 @@ public final class Promise10Decode {
     }
 
     private static void linearFaults() {
+        C = new Check();
+        C.schema(0, SCHEMA);
         // b, i, t, r, l, lt, lr, m, me, o, y, e
         String t = "00000001 64000000";
         String zeros = Check.times("00000000", 8);
@@ -184,6 +195,8 @@ public final class Promise10Decode {
     }
 
     private static void slottedValues() {
+        C = new Check();
+        C.schema(0, SCHEMA);
         good(2, Check.word(0), "R{}");
         good(2, Check.word(0xfffffffcL), "R{}");
         good(2, Check.word(1L << 32) + Check.word(1 | 5L << 32), "R{b:false,i:5}");
@@ -204,6 +217,8 @@ public final class Promise10Decode {
     }
 
     private static void slottedFaults() {
+        C = new Check();
+        C.schema(0, SCHEMA);
         bad(2, "", 1, 0);
         bad(2, "00000000000000", 1, 7);
         bad(2, Check.word(0) + "00", 1, 9);
@@ -236,6 +251,8 @@ public final class Promise10Decode {
         bad(2, root(p, Check.word(list(at, end, 7, 0))) + Check.word(1), 9, end * 8);
         bad(2, root(p, Check.word(list(at, end, 7, 1))) + Check.word(1L << 2) + Check.word(0), 9, end * 8);
         good(2, root(p, Check.word(list(at, end, 7, 1))) + Check.word(1L << 2 | 1L << 32) + Check.word(1), "R{lr:[{b:false}]}");
+        C = new Check();
+        C.schema(0, SCHEMA);
         bad(2, root(p, Check.word(list(at, end, 7, 0))) + Check.word(401L << 2), 7, at * 8);
         bad(2, root(p, Check.word(list(at, end, 7, 0))) + Check.word(0xfffffffcL), 7, at * 8);
         p = pointer(8);
@@ -251,6 +268,8 @@ public final class Promise10Decode {
     }
 
     private static void slottedWalks() {
+        C = new Check();
+        C.schema(0, SCHEMA);
         int data = C.house.type(0, R, 3);
         int pointers = C.house.type(0, R, 4);
         int each = data + pointers;
@@ -314,7 +333,7 @@ public final class Promise10Decode {
             String head = kind.equals("ulong") ? "0a0b" : "0a09";
             c.load(0, head + most + (kind.equals("ulong") ? "0a02" : "0a09") + one);
             Check.due("a STREAM in another order", c.house.decode(0, 0, 0, 0, 0), 5);
-            Check.due("by size", c.printed(0), "L{m:<1:false,18446744073709551615:false>}");
+            c.printed("by size", 0, "L{m:<1:false,18446744073709551615:false>}");
             for (int format = 1; format < 3; format++) {
                 c.house.encode(0, format, 1);
                 Check.due("in order", c.house.decode(0, 0, format, 1, 1), 5);
@@ -335,7 +354,7 @@ public final class Promise10Decode {
         c.load(0, "1002 0801 2005 2006");
         Check.due("b, then a, and two unknown ones", c.house.decode(0, 0, 0, 0, 0), 3);
         c.house.encode(0, 0, 1);
-        Check.due("all of them", c.hex(1), "080120052006");
+        c.bytes("all of them", 1, "080120052006");
     }
 
     /** Records of a MAP with fewer words than their LAYOUT has. */
@@ -345,10 +364,10 @@ public final class Promise10Decode {
         String top = Check.word(2L << 48);
         c.load(0, top + Check.word(list(1, 3, 7, 2)) + Check.word(0) + Check.word(2L << 2 | 1L << 32) + Check.word(1) + Check.word(2));
         Check.due("without pointers", c.house.decode(0, 1, 2, 0, 0), 5);
-        Check.due("no bytes", c.printed(0), "L{m:<1:\"\",2:\"\">}");
+        c.printed("no bytes", 0, "L{m:<1:\"\",2:\"\">}");
         c.load(0, top + Check.word(0) + Check.word(list(2, 3, 7, 0)) + Check.word(1L << 2) + Check.word(2) + Check.word(3));
         Check.due("without anything", c.house.decode(0, 1, 2, 0, 0), 3);
-        Check.due("no bytes, an empty record", c.printed(0), "L{t:<\"\":{}>}");
+        c.printed("no bytes, an empty record", 0, "L{t:<\"\":{}>}");
     }
 
     /** 1000 words may be WALKED: three by the top, and those of three records that are one. */
@@ -385,8 +404,10 @@ public final class Promise10Decode {
             c.load(0, top + Check.word((long) n << 2));
             Check.due(n + " records without words", c.house.decode(0, 1, 2, 0, 0), n + 1);
             Check.due("their field and they are SET", c.house.told(0, 2), n + 1);
-            Check.due("in text", c.printed(0), "Q{a:[{}" + Check.times(",{}", n - 1) + "]}");
+            c.printed("in text", 0, "Q{a:[{}" + Check.times(",{}", n - 1) + "]}");
         }
+        c = new Check();
+        c.schema(0, WIDE);
         c.load(0, top + Check.word(400L << 2));
         c.fault("401 VALUES", c.house.decode(0, 1, 2, 0, 0), 7, 0);
         c.load(0, top + Check.word(401L << 2));
@@ -394,6 +415,8 @@ public final class Promise10Decode {
         // a word each of zeros: still their DEFAULTS
         c.load(0, Check.word(1L << 48) + Check.word(list(1, 2, 7, 390)) + Check.word(390L << 2 | 1L << 32) + Check.times(Check.word(0), 390));
         Check.due("390 records of a word", c.house.decode(0, 1, 2, 0, 0), 391);
+        c = new Check();
+        c.schema(0, WIDE);
         // the last word is that of a fault, which comes ahead of LARGE
         c.load(0, Check.word(4L << 48) + Check.word(list(1, 5, 7, 0)) + Check.word(0) + Check.word(0) + Check.word(2) + Check.word(399L << 2));
         c.fault("behind all of them", c.house.decode(0, 1, 2, 0, 0), 2, 32);
@@ -424,7 +447,9 @@ public final class Promise10Decode {
         Check.due("70 records without anything SET", c.house.decode(0, 1, 2, 0, 0), 71);
         Check.due("no BYTES", c.house.told(0, 3), 0);
         // a one's fields that take one another away, in a STREAM
-        c.schema(0, "record Q { one o { bool a @ 1; int b @ 2; text t @ 3; Q q @ 4; } text s @ 5 = \"abc\"; map<int, Q> m @ 6; many bool l @ 7; }");
+        String ring = "record Q { one o { bool a @ 1; int b @ 2; text t @ 3; Q q @ 4; } text s @ 5 = \"abc\"; map<int, Q> m @ 6; many bool l @ 7; }";
+        c = new Check();
+        c.schema(0, ring);
         c.load(0, Check.times("0801 1002 1a0178 2200", 363) + "0800 2a03616263");
         Check.due("the last of a one", c.house.decode(0, 0, 0, 0, 0), 1);
         StringBuilder maps = new StringBuilder();
@@ -433,19 +458,30 @@ public final class Promise10Decode {
             records.append("map<int, bool> m" + i + " @ " + i + "; ");
             maps.append(String.format("%02x00", i * 8 + 2));
         }
+        records.append("} record R { one o { Q a @ 1; Q b @ 2; bool c @ 3; } map<int, Q> m @ 4; }");
         Check d = new Check();
-        d.schema(0, records + "} record R { one o { Q a @ 1; Q b @ 2; bool c @ 3; } map<int, Q> m @ 4; }");
+        d.schema(0, records.toString());
         String fifteen = "1e" + maps;
         d.load(0, Check.times("0a" + fifteen + "12" + fifteen, 62));
         Check.due("MAPS of a one's records that went", d.house.decode(0, 1, 0, 0, 0), 46);
+        d = new Check();
+        d.schema(0, records.toString());
         d.load(0, Check.times("0a" + fifteen + "1800", 117));
         Check.due("all of them went", d.house.decode(0, 1, 0, 0, 0), 1);
+        d = new Check();
+        d.schema(0, records.toString());
         d.load(0, Check.times("222012" + fifteen, 117));
         Check.due("MAPS in a MAP's item that another one took the place of", d.house.decode(0, 1, 0, 0, 0), 48);
+        c = new Check();
+        c.schema(0, ring);
         c.load(0, Check.times("3200", 2000));
         Check.due("2000 times one key", c.house.decode(0, 0, 0, 0, 0), 3);
+        c = new Check();
+        c.schema(0, ring);
         c.load(0, Check.times("3204 1202 2200", 600) + Check.times("2a03616263", 80));
         Check.due("600 items of one key", c.house.decode(0, 0, 0, 0, 0), 4);
+        c = new Check();
+        c.schema(0, ring);
         c.load(0, "3ae31e" + Check.times("01", 3939));
         c.fault("3939 items", c.house.decode(0, 0, 0, 0, 0), 7, 0);
     }
@@ -457,10 +493,12 @@ public final class Promise10Decode {
 
     private static void bytes(String path, String due) {
         asks(path, 2, due.length());
-        Check.due("bytes of " + path, C.text(5), due);
+        C.row("bytes of " + path, 5, due);
     }
 
     private static void asked() {
+        C = new Check();
+        C.schema(0, SCHEMA);
         C.read(0, 0, "R {i: -3, r: {t: \"abc\", lt: [\"x\", \"\"]}, l: [4, 5], lr: [{i: 6}, {}], m: <\"k\": {i: 7}, \"\": {}>, me: <-1: B>, q: {r: {}}, y: \"\\x00\"}");
         asks("i", 1, -3);
         asks("b", 1, 1);
@@ -471,7 +509,7 @@ public final class Promise10Decode {
         bytes("y", "\u0000");
         asks("r", 3, R);
         asks("l", 4, 2);
-        Check.due("the row has what came last", C.text(5), "\u0000");
+        C.row("the row has what came last", 5, "\u0000");
         asks("l[1]", 1, 5);
         asks("l[2]", 0, 0);
         asks("l[-1]", 0, 0);

@@ -1,10 +1,9 @@
 /** Promise 11: put, remove, merge. */
 public final class Promise11Change {
-    private static final Check C = new Check();
+    private static Check C = new Check();
     private static final String SCHEMA = "enum E { A = 1; B = 7; } record R { int i @ 2 = 5; text t @ 3 = \"d\"; R r @ 4; many int l @ 5; many R lr @ 7; map<text, R> m @ 8; map<int, E> me @ 9; one o { text p @ 10; long j @ 12; R q @ 13; } maybe bytes y @ 14; many text lt @ 15; } record N { int i @ 1; }";
 
     public static void main(String[] args) {
-        C.schema(0, SCHEMA);
         puts();
         putFaults();
         nothing();
@@ -16,10 +15,12 @@ public final class Promise11Change {
 
     private static void put(String text, int values, String due) {
         Check.due(text, C.put(0, text), values);
-        Check.due("printed behind " + text, C.printed(0), due);
+        C.printed("printed behind " + text, 0, due);
     }
 
     private static void puts() {
+        C = new Check();
+        C.schema(0, SCHEMA);
         C.read(0, 0, "R {}");
         put("i = 6", 1, "R{i:6}");
         put("i = 5", 0, "R{}");
@@ -59,11 +60,14 @@ public final class Promise11Change {
 
     private static void wrong(String text, int fault, int at) {
         C.read(0, 0, "R {i: 77}");
+        C.house.copy(0, 11);
         C.fault(text, C.put(0, text), fault, at);
-        Check.due("the message stays", C.printed(0), "R{i:77}");
+        Check.due("the message stays", C.house.same(0, 11), 1);
     }
 
     private static void putFaults() {
+        C = new Check();
+        C.schema(0, SCHEMA);
         wrong("", 2, 0);
         wrong("x = 1", 5, 0);
         wrong("i", 2, 1);
@@ -94,11 +98,13 @@ public final class Promise11Change {
     private static void nothing(String text) {
         C.read(0, 0, "R {i: 77, l: [1], lr: [{}], j: 4}");
         Check.due(text, C.put(0, text), Check.NO);
-        Check.due("the message stays", C.printed(0), "R{i:77,l:[1],lr:[{}],j:4}");
+        C.printed("the message stays", 0, "R{i:77,l:[1],lr:[{}],j:4}");
         Check.due("the tape is empty", C.house.net(4), 0);
     }
 
     private static void nothing() {
+        C = new Check();
+        C.schema(0, SCHEMA);
         nothing("l[2] = 1");
         nothing("l[-1] = 1");
         nothing("lr[2].i = 1");
@@ -120,6 +126,8 @@ public final class Promise11Change {
     }
 
     private static void putLimits() {
+        C = new Check();
+        C.schema(0, SCHEMA);
         C.read(0, 0, "R {}");
         String dots = Check.times("r.", 11);
         Check.due("eleven .", C.put(0, dots + "i = 1"), 12);
@@ -147,10 +155,12 @@ public final class Promise11Change {
 
     private static void take(String path, int values, String due) {
         Check.due("remove " + path, C.remove(0, path), values);
-        Check.due("printed then", C.printed(0), due);
+        C.printed("printed then", 0, due);
     }
 
     private static void removes() {
+        C = new Check();
+        C.schema(0, SCHEMA);
         C.read(0, 0, "R {i: 1, r: {l: [1, 2, 3], t: \"\"}, me: <1: A, 2: B>, lr: [{}, {i: 1}], p: \"x\", y: \"\", m: <\"a\": {q: {}}>}");
         String due = "R{r:{t:\"\",l:[1,2,3]},lr:[{},{i:1}],m:<\"a\":{q:{}}>,me:<1:A,2:B>,p:\"x\",y:\"\"}";
         take("i", 21, due);
@@ -185,12 +195,14 @@ public final class Promise11Change {
         C.read(0, 0, one);
         C.read(0, 1, two);
         Check.due("merge " + one + " " + two, C.house.merge(0, 1), values);
-        Check.due("MERGED", C.printed(0), due);
+        C.printed("MERGED", 0, due);
         C.read(0, 2, two);
         Check.due("n stays", C.house.same(1, 2), 1);
     }
 
     private static void merges() {
+        C = new Check();
+        C.schema(0, SCHEMA);
         merge("R {i: 1, t: \"a\"}", "R {i: 2}", 2, "R{i:2,t:\"a\"}");
         merge("R {i: 1}", "R {i: 5}", 1, "R{i:1}");
         merge("R {r: {i: 1}}", "R {r: {t: \"b\"}}", 3, "R{r:{i:1,t:\"b\"}}");
@@ -201,7 +213,7 @@ public final class Promise11Change {
         merge("R {y: \"1\"}", "R {y: \"\"}", 1, "R{y:\"\"}");
         C.read(0, 0, "R {l: [1, 2], i: 3}");
         Check.due("merge with itself", C.house.merge(0, 0), 6);
-        Check.due("MERGED", C.printed(0), "R{i:3,l:[1,2,1,2]}");
+        C.printed("MERGED", 0, "R{i:3,l:[1,2,1,2]}");
         C.load(0, "7801 2202 7802");
         C.house.decode(0, 1, 0, 0, 0);
         C.house.decode(0, 1, 0, 0, 1);

@@ -1,6 +1,6 @@
 /** Promise 12: differ, path, judge. */
 public final class Promise12Judge {
-    private static final Check C = new Check();
+    private static Check C = new Check();
     private static final int ALIKE = 0, WIDER = 1, LOSES = 2, BREAKS = 3;
     private static final int STREAM = 0, LINEAR = 1, SLOTTED = 2;
 
@@ -79,6 +79,7 @@ public final class Promise12Judge {
     private static void judge(int format, String old, String fresh, int due, int where) {
         String rest = " record N { int n @ 1; } record M { long n @ 1; } record X { text n @ 1; } enum E { A = 1; B = 2; } enum F { A = 1; C = 3; } enum G { A = 1; B = 2; C = 3; }";
         String what = format + ": " + old + " as " + fresh;
+        C = new Check();
         Check.due("schema", C.schema(0, "record R {" + old + "}" + rest), 7);
         Check.due("schema", C.schema(1, "record R {" + fresh + "}" + rest), 7);
         Check.due(what, C.house.judge(0, 0, 1, 0, format), due);

@@ -38,7 +38,7 @@ public final class Promise16Outcome {
         Check.due("ANSWERED", X.outcome(2, 0, 0), 1);
         Check.due("code", X.outcome(2, 0, 1), 0);
         Check.due("take", X.take(2, 0, 5), 2);
-        Check.due("the answer", C.printed(5), "B{l:-7,b:true}");
+        C.printed("the answer", 5, "B{l:-7,b:true}");
         Check.due("once more", X.take(2, 0, 0), 2);
         Check.due("FAILED", X.outcome(2, 1, 0), 2);
         Check.due("code", X.outcome(2, 1, 1), 4);
