@@ -260,7 +260,7 @@ public final class Edges03Messages {
     private static void commas() {
         begin();
         wrong(2, "R{^,}");
-        wrong(2, "R{i:1^ u:2}".replace("^ ", " ^"));
+        wrong(2, "R{i:1 ^u:2}");
         wrong(2, "R{i:1,^}");
         wrong(2, "R{i:1,^,u:2}");
         wrong(2, "R{i:1^");
@@ -273,14 +273,14 @@ public final class Edges03Messages {
         wrong(2, "R{^int:1}");
         wrong(2, "R{li:[^,]}");
         wrong(2, "R{li:[1,^]}");
-        wrong(2, "R{li:[1^ 2]}".replace("^ ", " ^"));
+        wrong(2, "R{li:[1 ^2]}");
         wrong(2, "R{li:[1^>}");
         wrong(2, "R{li:[1^}");
         wrong(2, "R{li:[^");
         wrong(2, "R{mr:<^,>}");
         wrong(2, "R{mr:<1^>}");
         wrong(2, "R{mr:<1:^>}");
-        wrong(2, "R{mr:<1:{}^ 2:{}>}".replace("^ ", " ^"));
+        wrong(2, "R{mr:<1:{} ^2:{}>}");
         wrong(2, "R{mr:<1:{},^>}");
         wrong(2, "R{mr:<1^,{}>}");
         wrong(2, "R{mr:<1:{}^]}");

@@ -469,7 +469,7 @@ public final class Edges05Linear {
         c.load(0, "0805 f80c01 1205 f80c02 0806");
         Check.due("with unknown fields", c.house.decode(0, R, 0, 0, 0), 5);
         Check.due("LINEAR", c.house.encode(0, 1, 1), 16);
-        c.bytes("without them", 1, "00000005 00000001 00000006 00000000".replace(" ", ""));
+        c.bytes("without them", 1, "00000005000000010000000600000000");
         begin("");
         c.load(0, "f80c01");
         c.house.decode(0, R, 0, 0, 0);
