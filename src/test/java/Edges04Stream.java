@@ -23,6 +23,7 @@ public final class Edges04Stream {
         readOn();
         ones();
         entries();
+        entriesAnew();
         entriesPassOver();
         endsTooSoon();
         endsWithin();
@@ -353,6 +354,14 @@ public final class Edges04Stream {
         // another WIRE is not the field
         good(R, "a00101 a80100", 2, "R{oi:1}");
         good(R, "a00101 b00100 b80100", 3, "R{oi:1}");
+        // what stands between the one's fields, and what is unknown, stays
+        c.schema(1, "record T { one o { int a @ 1; int b @ 3; } int x @ 2; int y @ 4; }");
+        for (String hex : new String[] {"1005 1801 0801 f80c01", "1801 1005 0801 f80c01", "0801 1005 1801 f80c01", "1005 0801 f80c01 1801"}) {
+            c.load(0, hex);
+            Check.due(hex, c.house.decode(1, 0, 0, 0, 2), 3);
+            c.house.encode(2, 0, 2);
+            c.bytes(hex, 2, (hex.indexOf("0801") > hex.indexOf("1801") ? "08011005" : "10051801") + "f80c01");
+        }
         // within a record it is another one
         good(R, "a00101 6a03a00102", 3, "R{r:{oi:2},oi:1}");
         bad(R, "a00101 aa0101 ^ff", 5);
@@ -387,6 +396,21 @@ public final class Edges04Stream {
         good(L, "6a05 0dffffffff 6a05 0d01000000", 5, "L{fb:<1:false,4294967295:false>}");
         good(L, "7a02 0801 7a02 0802", 5, "L{zr:<-1:{},1:{}>}");
         good(L, "62030a0162 62040a026161 62030a0161", 7, "L{te:<\"a\":A,\"aa\":A,\"b\":A>}");
+        good(L, "62050a03786263 62050a03786262 62040a027862 62050a03786162 62040a027863", 11, "L{te:<\"xab\":A,\"xb\":A,\"xbb\":A,\"xbc\":A,\"xc\":A>}");
+    }
+
+    /** An item comes in place of one with its key, with nothing of what that was. */
+    private static void entriesAnew() {
+        begin();
+        good(L, "6a021001 6a00", 3, "L{fb:<0:false>}");
+        good(L, "7203120161 7200", 3, "L{lx:<0:\"\">}");
+        good(L, "7a0412021805 7a021200", 3, "L{zr:<0:{}>}");
+        good(L, "5a051203f80c01 5a051203f80c02", 4, "L{ml:<0:{}>}");
+        Check.due("one unknown field", c.house.told(1, 5), 1);
+        c.house.encode(1, 0, 2);
+        c.bytes("the later one", 2, "5a0708001203f80c02");
+        good(L, "5a061204 12020101 5a041202 1003", 5, "L{ml:<0:{li:[3]}>}");
+        good(L, "5a041202 1003 1001 5a00", 5, "L{li:[1],ml:<0:{}>}");
     }
 
     private static void entriesPassOver() {

@@ -570,6 +570,9 @@ public final class Edges06Slotted {
         bad(10, 2, top, 0, list(2, 7, 2), 0, 0, rec(2, 0, 1), list(1, 2, 2), list(0, 2, 2), 'a');
         bad(10, 2, top, 0, list(2, 7, 2), 0, 0, rec(2, 0, 1), 0, list(0, 2, 1), 0);
         bad(10, 2, top, 0, list(2, 7, 2), 0, 0, rec(2, 0, 1), list(1, 2, 3), list(0, 2, 2), 'a');
+        good(5, "R{t:<\"xb\":0,\"xc\":0>}", top, 0, list(2, 7, 2), 0, 0, rec(2, 0, 1), list(1, 2, 3), list(1, 2, 3), 0x6278, 0x6378);
+        bad(10, 2, top, 0, list(2, 7, 2), 0, 0, rec(2, 0, 1), list(1, 2, 3), list(1, 2, 3), 0x6378, 0x6278);
+        bad(10, 2, top, 0, list(2, 7, 2), 0, 0, rec(2, 0, 1), list(1, 2, 3), list(1, 2, 3), 0x6278, 0x6278);
         good(5, "R{w:<1:0,9223372036854775808:0>}", top, 0, 0, list(1, 7, 4), 0, rec(2, 2, 0), 1, 0, Long.MIN_VALUE, 0);
         bad(10, 3, top, 0, 0, list(1, 7, 4), 0, rec(2, 2, 0), Long.MIN_VALUE, 0, 1, 0);
         good(5, "R{u:<1:true,4294967295:false>}", top, 0, 0, 0, list(0, 7, 2), rec(2, 1, 0), 0x100000001L, 0xffffffffL);

@@ -4,13 +4,13 @@ import java.nio.charset.StandardCharsets;
 
 /** Promise 7: which bytes a text may have, compared with what Java's own reader of UTF-8 takes. */
 public final class Promise07Utf8 {
-    private static final String[] BEHIND = {"", "80", "8080", "bfbf", "80bf41", "4180", "c3"};
+    private static final String[] BEHIND = {"", "80", "8080", "bfbf", "80bf41", "4180", "c3", "7f80", "807f", "c080", "80c0", "bf7f", "bfc0"};
     private static Check c;
     private static int tried;
 
     public static void main(String[] args) {
         for (int a = 120; a < 256; a++) {
-            for (int b = 0; b < 256; b += b > 120 && b < 200 ? 1 : 13) {
+            for (int b = 0; b < 256; b += b >= 117 && b < 200 ? 1 : 13) {
                 for (String behind : BEHIND) {
                     one(String.format("%02x%02x", a, b) + behind);
                 }
