@@ -127,6 +127,14 @@ public final class Edges03Messages {
         wrong(4, "R{oi:1,^ot?");
         good("R{r:{oi:1},ot:\"\"}", 3, "R{r:{oi:1},ot:\"\"}");
         good("R{or:{or:{}}}", 2, "R{or:{or:{}}}");
+        c.schema(0, "record R { int i @ 1; one o { int a @ 2; int b @ 3; } one p { int c @ 4; int d @ 5; } one q { int e @ 6; int f @ 7; } }");
+        good("R{f:1,d:2,b:3}", 3, "R{b:3,d:2,f:1}");
+        good("R{a:1,c:2,e:3}", 3, "R{a:1,c:2,e:3}");
+        wrong(4, "R{a:1,^b:1}");
+        wrong(4, "R{a:1,c:1,^d:1}");
+        wrong(4, "R{a:1,c:1,e:1,^f:1}");
+        wrong(4, "R{d:1,b:1,f:1,^c:1}");
+        wrong(4, "R{f:1,i:1,^e:1}");
     }
 
     private static void keysInOrder() {

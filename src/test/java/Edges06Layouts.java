@@ -20,6 +20,7 @@ public final class Edges06Layouts {
         recordsWritten();
         mapsWritten();
         orderOfObjects();
+        deepWritten();
         mostWritten();
         Check.end();
     }
@@ -341,6 +342,26 @@ public final class Edges06Layouts {
             rec(2, 0, 4), list(7, 2, 2), rec(7, 0, 4), 0, 0, list(9, 2, 2), 0, 0, 0,
             '4', list(3, 2, 2), 0, 0, 0, '5', '6',
             list(0, 2, 2), '7');
+    }
+
+    /** Messages of 12 records within one another are WRITTEN, and READ again, in each format. */
+    private static void deepWritten() {
+        String[] types = {"R", "many R", "map<int, R>", "map<text, R>", "maybe R"};
+        String[] ways = {"r:", "r:[", "r:<-1:", "r:<\"a\":{},\"b\":", "r:"};
+        String[] ends = {"", "]", ">", ">", ""};
+        for (int i = 0; i < 6; i++) {
+            int k = i % 5;
+            begin(i == 5 ? "one o { int i @ 1; R r @ 2; }" : "int i @ 1; " + types[k] + " r @ 2;");
+            String text = "R" + Check.times("{" + ways[k], 11) + "{i:7}" + Check.times(ends[k] + "}", 11);
+            Check.due("12 deep", c.read(0, 0, text) > 0 ? c.house.told(0, 4) : 0, 12);
+            for (int format = 0; format < 3; format++) {
+                Check.due("encode of " + text, c.house.encode(0, format, 3) > 0 ? 1 : 0, 1);
+                Check.due("decode", c.house.decode(0, 2, format, 3, 1), c.house.told(0, 2));
+                Check.due("the same", c.house.same(0, 1), 1);
+                Check.due("12 deep", c.house.told(1, 4), 12);
+            }
+            c.printed("it", 1, text);
+        }
     }
 
     private static void mostWritten() {

@@ -314,6 +314,13 @@ public final class Edges08Judge {
         judge(LINEAR, "one o { N a @ 7; }", "one p { M x @ 7; }", B, 7);
         judge(LINEAR, "one o { N a @ 7; }", "one p { N x @ 7; }", A, 0);
         judge(LINEAR, "one o { int a @ 7; }", "one p { int x @ 8; }", B, 7);
+        // not elsewhere in NEW
+        judge(LINEAR, "one o { int a @ 7; int b @ 6; } int c @ 5;", "one p { int x @ 7; } int y @ 6;", B, 6);
+        judge(LINEAR, "one o { int a @ 7; } one p { int b @ 6; }", "one o { int b @ 6; } one p { int a @ 7; }", B, 6);
+        // what stands behind a one
+        judge(LINEAR, "one o { int a @ 7; } int b @ 8;", "one o { int a @ 7; } text b @ 8;", B, 8);
+        judge(LINEAR, "one o { int a @ 7; int c @ 1; } int b @ 8;", "one o { int a @ 7; int c @ 1; } zint b @ 8;", W, 8);
+        judge(LINEAR, "int b @ 8; one o { int a @ 7; int c @ 1; }", "int b @ 8; one o { int a @ 7; int c @ 1; int d @ 2; }", A, 0);
     }
 
     private static void slottedPlaces() {

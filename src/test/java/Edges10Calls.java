@@ -29,6 +29,7 @@ public final class Edges10Calls {
         keptWhole();
         partsTwice();
         remembersSix();
+        remembersBytes();
         remembersOldest();
         remembersByClient();
         partsOfRemembered();
@@ -553,6 +554,28 @@ public final class Edges10Calls {
         Check.due("the eighth", x.ran(0), 8);
         x.deliver(0);
         Check.due("call 2 is remembered", x.ran(0), 8);
+    }
+
+    /** What is sent again is the answer to that call, however many came behind it. */
+    private static void remembersBytes() {
+        begin(0);
+        for (int i = 0; i < 9; i++) {
+            x.invoke(0, 0, 0);
+            x.twice(x.net(0) - 1);
+            x.deliver(x.net(0) - 1);
+            x.lose(x.net(0) - 1);
+        }
+        Check.due("a LETTER of each call", x.net(0), 9);
+        Check.due("DONE", x.ran(0), 9);
+        for (int i = 0; i < 6; i++) {
+            Check.due("deliver", x.deliver(3), 9);
+            Check.due("DONE", x.ran(0), 9);
+            Check.due("its XID", x.letter(8, 2), 3 + i);
+            Check.due("its bytes", body(8), String.format("%08x0000000008%02x", 3 + i, 4 + i));
+        }
+        Check.due("one that it has forgotten", x.deliver(2), 9);
+        Check.due("is DONE", x.ran(0), 10);
+        Check.due("its bytes", body(8), "0000000200000000080a");
     }
 
     /** That an answer is sent again does not keep it longer. */
