@@ -25,6 +25,7 @@ public final class Edges03Messages {
         keysOfKinds();
         whatBeginsNoValue();
         deepAndLarge();
+        allOfThem();
         messageStays();
         printed();
         Check.end();
@@ -458,6 +459,36 @@ public final class Edges03Messages {
         wrong(3, "R{" + many + ",r:" + Check.times("{r:", 11) + "^{" + Check.times("}", 12) + "}");
         wrong(3, "R" + Check.times("{r:", 12) + "^{ " + many);
         wrong(3, "^ R{" + many + "}");
+    }
+
+    /** All schemas, messages, rows: what one is told does not touch another. */
+    private static void allOfThem() {
+        c = new Check();
+        for (int s = 0; s < 4; s++) {
+            c.schema(s, "record Z { } record R" + s + " { int x @ 1; }");
+        }
+        for (int m = 0; m < 12; m++) {
+            Check.due("read", c.read(m % 4, m, "R" + m % 4 + "{x:" + (m + 1) + "}"), 1);
+        }
+        for (int m = 0; m < 12; m++) {
+            Check.due("its schema", c.house.told(m, 0), m % 4);
+            Check.due("its record", c.house.told(m, 1), 1);
+            c.printed("it", m, "R" + m % 4 + "{x:" + (m + 1) + "}");
+        }
+        for (int row = 0; row < 8; row++) {
+            c.house.print(row, row);
+        }
+        for (int row = 0; row < 8; row++) {
+            Check.due("row " + row, c.text(row), "R" + row % 4 + "{x:" + (row + 1) + "}");
+        }
+        Check.due("copy", c.house.copy(0, 11), 1);
+        c.put(11, "x = 7");
+        c.printed("apart from what it was copied of", 0, "R0{x:1}");
+        c.house.drop(0);
+        c.printed("and stays when that goes", 11, "R0{x:7}");
+        c.schema(3, "");
+        Check.due("those of schema 3 are gone", c.house.told(3, 0) + c.house.told(7, 0), 2 * Check.NO);
+        Check.due("11 is of schema 0 now", c.house.told(11, 0), 0);
     }
 
     private static void messageStays() {

@@ -362,6 +362,21 @@ public final class Edges06Layouts {
             }
             c.printed("it", 1, text);
         }
+        // lists within one another, and a record in the last of them
+        begin("R r @ 1; many R l @ 2; map<int, R> m @ 3; one o { R q @ 4; int i @ 5; }");
+        String[] within = {"l:[", "m:<1:", "r:", "q:"};
+        String[] behind = {"]", ">", "", ""};
+        for (int i = 0; i < 4; i++) {
+            for (int k = 2; k < 4; k++) {
+                String text = "R{" + Check.times(within[i] + "{", 10) + within[k] + "{i:7}" + Check.times("}" + behind[i], 10) + "}";
+                Check.due(text, c.read(0, 0, text) > 0 ? c.house.told(0, 4) : 0, 12);
+                for (int format = 0; format < 3; format++) {
+                    c.house.encode(0, format, 3);
+                    Check.due("decode in " + format + " of " + text, c.house.decode(0, 2, format, 3, 1), c.house.told(0, 2));
+                    Check.due("the same", c.house.same(0, 1), 1);
+                }
+            }
+        }
     }
 
     private static void mostWritten() {

@@ -39,6 +39,7 @@ public final class Edges07Paths {
         mergeRefused();
         differences();
         differencesWithin();
+        lastOfAll();
         pathsKept();
         Check.end();
     }
@@ -818,6 +819,31 @@ public final class Edges07Paths {
         c.house.decode(0, R, 0, 0, 1);
         Check.due("unknown fields do not count", c.house.differ(0, 1), 0);
         Check.due("with itself", c.house.differ(0, 0), 0);
+    }
+
+    /** The last schema, messages, row. */
+    private static void lastOfAll() {
+        c = new Check();
+        c.schema(0, "record A { int x @ 1; int y @ 2; }");
+        c.schema(3, "record Q { } record R { int a @ 1; int b @ 2; R r @ 3; }");
+        c.read(0, 0, "A{x:1}");
+        c.read(0, 1, "A{y:1}");
+        c.read(3, 11, "R{a:1,r:{b:1}}");
+        c.read(3, 10, "R{a:1,r:{a:1}}");
+        Check.due("before", c.house.differ(0, 1), 2);
+        Check.due("differ", c.house.differ(11, 10), 2);
+        Check.due("path", c.house.path(0, 6), 3);
+        c.row("it", 6, "r.a");
+        Check.due("path", c.house.path(1, 7), 3);
+        c.row("it", 7, "r.b");
+        Check.due("put", c.put(11, "r.a = 2"), 4);
+        Check.due("ask", c.ask(11, 7, "r.a"), 1);
+        Check.due("number", c.house.number(), 2);
+        Check.due("merge", c.house.merge(11, 10), 4);
+        c.printed("MERGED", 11, "R{a:1,r:{a:1,b:1}}");
+        Check.due("remove", c.remove(11, "r"), 1);
+        c.printed("TAKEN AWAY", 11, "R{a:1}");
+        c.printed("no other", 10, "R{a:1,r:{a:1}}");
     }
 
     /** The DIFFERENCES are those of the latest differ() that told a number, whatever became of its messages. */

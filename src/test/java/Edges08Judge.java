@@ -36,6 +36,7 @@ public final class Edges08Judge {
         maps();
         records();
         rings();
+        ofAllSchemas();
         refused();
         Check.end();
     }
@@ -456,6 +457,31 @@ public final class Edges08Judge {
         // a ring in OLD alone
         ring(STREAM, "record A { A a @ 1; }", "record A { B a @ 1; } record B { B a @ 1; }", A, 0);
         ring(STREAM, "record A { A a @ 1; }", "record A { B a @ 1; } record B { text a @ 1; }", B, 1);
+    }
+
+    /** Whatever schemas they are of, and of one schema. */
+    private static void ofAllSchemas() {
+        for (int s = 0; s < 4; s++) {
+            for (int t = 0; t < 4; t++) {
+                Check c = new Check();
+                c.schema(s, "record N { } record R { int a @ 7; int b @ 6; } record Q { uint a @ 7; long b @ 6; }");
+                Check.due("of one schema", c.house.judge(s, 1, s, 2, 0), L);
+                Check.due("where", c.house.where(), 7);
+                Check.due("the other way", c.house.judge(s, 2, s, 1, 0), L);
+                Check.due("where", c.house.where(), 6);
+                if (s != t) {
+                    c.schema(t, "enum E { A = 1; } record N { } record X { zint a @ 7; zint b @ 6; } record R { long a @ 7; int b @ 6; }");
+                    Check.due("of two", c.house.judge(s, 1, t, 3, 0), W);
+                    Check.due("where", c.house.where(), 7);
+                    Check.due("the other way", c.house.judge(t, 3, s, 1, 0), L);
+                    Check.due("where", c.house.where(), 7);
+                    Check.due("LINEAR", c.house.judge(s, 1, t, 2, 1), W);
+                    Check.due("where", c.house.where(), 6);
+                    Check.due("SLOTTED", c.house.judge(t, 2, s, 1, 2), W);
+                    Check.due("where", c.house.where(), 6);
+                }
+            }
+        }
     }
 
     private static void refused() {

@@ -28,6 +28,8 @@ public final class Edges10Calls {
         keptTouched();
         keptWhole();
         partsTwice();
+        partsByClient();
+        lastOfAll();
         remembersSix();
         remembersBytes();
         remembersOldest();
@@ -519,12 +521,84 @@ public final class Edges10Calls {
         Check.due("part 0 once more: the answer is sent again", x.deliver(0), 2);
         Check.due("DONE once", x.ran(0), 1);
         Check.due("it keeps nothing", x.net(3), 0);
+        // of three parts the second one twice
+        begin(0);
+        c.load(3, "0803 1264" + Check.times("61", 100));
+        x.decode(0, 1, 0, 3, 1);
+        x.invoke(0, 0, 1);
+        Check.due("three parts", x.letter(0, 4), 3);
+        x.twice(1);
+        x.deliver(1);
+        x.deliver(2);
+        Check.due("two are there", x.net(3), 1);
+        Check.due("not all", x.deliver(0), 1);
+        Check.due("not DONE", x.ran(0), 0);
+        x.deliver(0);
+        Check.due("DONE", x.ran(0), 1);
         // parts in another order
         begin(0);
         x.invoke(0, 0, 1);
         x.deliver(1);
         x.deliver(0);
         Check.due("DONE", x.ran(0), 1);
+    }
+
+    /** Parts of two clients' calls with one XID do not meet. */
+    private static void partsByClient() {
+        begin(0);
+        x.client(1, 0, 0);
+        x.client(2, 0, 0);
+        x.invoke(0, 0, 1);
+        x.invoke(1, 0, 1);
+        x.invoke(2, 0, 1);
+        x.deliver(0);
+        x.deliver(2);
+        Check.due("part 0 of one, part 1 of another", x.net(3), 2);
+        Check.due("none is all there", x.ran(0), 0);
+        x.deliver(2);
+        Check.due("three calls", x.net(3), 3);
+        x.deliver(0);
+        Check.due("the first is all there", x.ran(0), 1);
+        Check.due("its answer", x.letter(2, 0), 0);
+        x.deliver(1);
+        Check.due("the last is all there", x.ran(0), 2);
+        Check.due("its answer", x.letter(2, 0), 2);
+        Check.due("one call", x.net(3), 1);
+        x.deliver(0);
+        Check.due("the second is all there", x.ran(0), 3);
+        Check.due("its answer", x.letter(2, 0), 1);
+    }
+
+    /** The last service of the last schema, the last client. */
+    private static void lastOfAll() {
+        c = new Check();
+        x = c.house;
+        c.schema(3, "service A { cell x; } record R { int x @ 1; } service B { cell p; cell q; call a (R) R @ 1 { q = in.x; } call b (R) R @ 2 { p = p + in.x; out.x = p; } }");
+        c.read(3, 11, "R{x:5}");
+        Check.due("server", x.server(3, 1, 2), 1);
+        Check.due("client", x.client(2, 3, 1), 1);
+        Check.due("a call", x.invoke(2, 1, 11), 0);
+        Check.due("its BODY", body(0).substring(0, 32), mark("B") + "00000000" + "00000002");
+        x.deliver(0);
+        Check.due("the answer", x.letter(0, 0), 2);
+        x.deliver(0);
+        Check.due("ANSWERED", x.outcome(2, 0, 0) * 10 + x.outcome(2, 0, 3), 11);
+        Check.due("take", x.take(2, 0, 10), 1);
+        c.printed("it", 10, "R{x:5}");
+        Check.due("of schema 3", x.told(10, 0), 3);
+        Check.due("cells", x.cell(0) * 10 + x.cell(1), 50);
+        Check.due("ran", x.ran(1) * 10 + x.ran(0), 10);
+        Check.due("no call more", x.ran(2), Check.BAD);
+        x.client(0, 3, 0);
+        Check.due("a service without calls", x.invoke(0, 0, 11), Check.BAD);
+        // the first one of a server has one cell and no calls
+        x.server(3, 0, 0);
+        Check.due("no call", x.ran(0), Check.BAD);
+        x.client(1, 3, 1);
+        x.invoke(1, 0, 11);
+        x.deliver(0);
+        x.deliver(0);
+        Check.due("another service's NAME", x.outcome(1, 0, 1), 1);
     }
 
     private static void remembersSix() {
@@ -782,6 +856,20 @@ public final class Edges10Calls {
         Check.due("part 1 of the second", x.outcome(0, 0, 0), 1);
         x.take(0, 0, 5);
         c.printed("what was there stays", 5, "B{a:-1,b:-1,c:-1,d:-1,e:-2}");
+        // the other way round: part 1 of the first, part 0 of the second
+        begin(0);
+        x.invoke(0, 2, 0);
+        x.twice(0);
+        x.deliver(0);
+        x.crash();
+        x.deliver(0);
+        x.deliver(1);
+        x.deliver(2);
+        Check.due("part 1 of both", x.outcome(0, 0, 0), 0);
+        x.deliver(1);
+        Check.due("part 0 of the second", x.outcome(0, 0, 0), 1);
+        x.take(0, 0, 5);
+        c.printed("what was there stays", 5, "B{a:-2,b:-2,c:-2,d:-2,e:-1}");
         // z: first two parts, then one, without anything SET
         begin(0);
         x.invoke(0, 1, 0);
