@@ -564,8 +564,7 @@ public final class Edges04Stream {
 
     private static void deepEntries() {
         begin();
-        String eleven = "L";
-        good(L, nested("4a", "5a00", 10), 23, eleven + Check.times("{ll:[", 10) + "{ml:<0:{}>}" + Check.times("]}", 10));
+        good(L, nested("4a", "5a00", 10), 23, "L" + Check.times("{ll:[", 10) + "{ml:<0:{}>}" + Check.times("]}", 10));
         Check.due("12 deep", c.house.told(1, 4), 12);
         // the KEY in its record
         bad(L, nested("4a", "5a02 ^1200", 11), 6);
@@ -585,7 +584,7 @@ public final class Edges04Stream {
         bad(L, nested("4a", "5a01 ^0b", 11), 4);
         bad(L, nested("4a", "5a0b 08 ^80808080808080808002", 11), 2);
         // items that are no records are not deeper
-        good(L, nested("4a", "7200", 11), 25, eleven + Check.times("{ll:[", 11) + "{lx:<0:\"\">}" + Check.times("]}", 11));
+        good(L, nested("4a", "7200", 11), 25, "L" + Check.times("{ll:[", 11) + "{lx:<0:\"\">}" + Check.times("]}", 11));
         bad(L, nested("4a", "6203 0a01 ^ff", 11), 5);
         bad(L, nested("8201", "5a03 08 01^", 11), 1);
     }
