@@ -500,6 +500,17 @@ public final class Edges05Linear {
         c.read(0, 0, "R{l:[{}" + Check.times(",{}", 397) + "]}");
         Check.due("no room", c.house.encode(0, 1, 3), Check.FULL);
         Check.due("the row stays without bytes", c.house.size(3), 0);
+        StringBuilder wide = new StringBuilder("many Q l @ 1; E z @ 2; } record Q { E e @ 24;");
+        for (int i = 1; i < 24; i++) {
+            wide.append(" long f").append(i).append(" @ ").append(i).append(";");
+        }
+        for (String last : new String[] {"z = 0", "l[396].e = 5"}) {
+            begin(wide.toString());
+            c.read(0, 0, "R{l:[{}" + Check.times(",{}", 396) + "]}");
+            Check.due("74 thousand bytes", c.house.encode(0, 1, 3), Check.FULL);
+            c.put(0, last);
+            Check.due("NO, however much there is ahead of it", c.house.encode(0, 1, 3), Check.NO);
+        }
         // a constant's number as DEFAULT that none has
         begin("maybe E b @ 2; E a @ 1 = 5;");
         c.read(0, 0, "R{}");

@@ -32,6 +32,7 @@ public final class Edges07Paths {
         putRefused();
         takenAway();
         takenNothing();
+        longPaths();
         removeFaults();
         merged();
         mergedOnes();
@@ -659,6 +660,33 @@ public final class Edges07Paths {
         for (String path : "l m lt lr[0].l lr[0].i u t s e b".split(" ")) {
             take(path, 3, "R{i:1,lr:[{}]}");
         }
+    }
+
+    /** As many parts as THE TAPE has room for, of a message that is full. */
+    private static void longPaths() {
+        begin("R{l:[0" + Check.times(",0", 392) + "],m:<0:{},1:{}>}");
+        Check.due("399 VALUES", c.house.told(0, 2), 399);
+        String path = "m[0]" + Check.times(".m[0]", 790);
+        asks(path, 0, 0);
+        begin("R{l:[0" + Check.times(",0", 392) + "],m:<0:{},1:{}>}");
+        Check.due("nothing to take away", c.remove(0, path), Check.NO);
+        begin("R{l:[0" + Check.times(",0", 392) + "],m:<0:{},1:{}>}");
+        wrongPut(3, Check.times("m[0].", 11) + "m[0]^.m[0]" + Check.times(".m[0]", 778));
+        asks("m[1]", 3, R);
+        // 2000 BYTES, and keys of 60
+        c = new Check();
+        c.schema(0, "record R { map<text, R> m @ 1; int i @ 2; many text t @ 3; }");
+        String key = "m[\"" + Check.times("k", 60) + "\"].";
+        c.read(0, 0, "R{}");
+        Check.due("12 deep", c.put(0, Check.times(key, 11) + "i = 7"), 34);
+        String sixty = "\"" + Check.times("x", 60) + "\"";
+        Check.due("2000 BYTES", c.put(0, "t = [" + Check.times(sixty + ",", 22) + "\"" + Check.times("y", 20) + "\"]"), 58);
+        Check.due("of them", c.house.told(0, 3), 2000);
+        asks(Check.times(key, 11) + "i", 1, 7);
+        asks(Check.times(key, 58) + "i", 0, 0);
+        Check.due("put", c.put(0, Check.times(key, 11) + "i = 0"), 57);
+        Check.due("remove", c.remove(0, Check.times(key, 10) + key.substring(0, key.length() - 1)), 54);
+        Check.due("ten keys", c.house.told(0, 3), 1940);
     }
 
     private static void removeFaults() {
