@@ -5,6 +5,7 @@ public final class Edges06Layouts {
     public static void main(String[] args) {
         empty();
         holes();
+        enums();
         flags();
         pointersAlone();
         ones();
@@ -21,6 +22,7 @@ public final class Edges06Layouts {
         mapsWritten();
         orderOfObjects();
         deepWritten();
+        withoutUnknown();
         mostWritten();
         Check.end();
     }
@@ -86,6 +88,45 @@ public final class Edges06Layouts {
         at(2, 48, -2, -2);
         at(17, 63, -2, -2);
         at(18, 64, -2, -2);
+    }
+
+    /** An enum has no LAYOUT. */
+    private static void enums() {
+        c = new Check();
+        StringBuilder constants = new StringBuilder();
+        for (int i = 1; i <= 16; i++) {
+            constants.append("A" + i + " = " + i + "; ");
+        }
+        c.schema(0, "record R { long a @ 1; text t @ 2; one o { int i @ 3; } } enum E { " + constants + "}");
+        c.schema(0, "enum E { " + constants + "} record R { E e @ 1; } enum F { " + constants + "}");
+        for (int k = 0; k < 3; k += 2) {
+            Check.due("an enum", c.house.type(0, k, 0), 0);
+            Check.due("constants", c.house.type(0, k, 1), 16);
+            for (int what = 2; what < 5; what++) {
+                Check.due("of an enum " + what, c.house.type(0, k, what), 0);
+            }
+        }
+        Check.due("D of the record", c.house.type(0, 1, 3), 1);
+    }
+
+    /** Unknown fields are not WRITTEN but in a STREAM. */
+    private static void withoutUnknown() {
+        begin("int i @ 1; R r @ 2; many R l @ 3; map<int, R> m @ 4; text t @ 5;");
+        c.load(0, "f80c01 0805 1207 0806 fa0c026162 1a03f80c01 220a 0803 1206 f80c05 f80c06 2a0161 f90c0102030405060708");
+        Check.due("with six unknown fields", c.house.decode(0, 2, 0, 0, 0) > 0 ? c.house.told(0, 5) : 0, 6);
+        c.printed("without them", 0, "R{i:5,r:{i:6},l:[{}],m:<3:{}>,t:\"a\"}");
+        c.read(0, 1, "R{i:5,r:{i:6},l:[{}],m:<3:{}>,t:\"a\"}");
+        for (int format = 1; format < 3; format++) {
+            Check.due("encode", c.house.encode(0, format, 2), c.house.encode(1, format, 3));
+            Check.due("the same bytes", c.house.equal(2, 3), 1);
+            c.house.decode(0, 2, format, 2, 4);
+            Check.due("READ, they are gone", c.house.same(1, 4), 1);
+        }
+        begin("");
+        c.load(0, "f80c01 fa0c00");
+        c.house.decode(0, 2, 0, 0, 0);
+        Check.due("a record without words", c.house.encode(0, 2, 3), 8);
+        c.bytes("at -1", 3, row(rec(-1, 0, 0)));
     }
 
     private static void flags() {

@@ -32,6 +32,7 @@ public final class Edges07Paths {
         putRefused();
         takenAway();
         takenNothing();
+        notInOrder();
         longPaths();
         removeFaults();
         merged();
@@ -660,6 +661,37 @@ public final class Edges07Paths {
         for (String path : "l m lt lr[0].l lr[0].i u t s e b".split(" ")) {
             take(path, 3, "R{i:1,lr:[{}]}");
         }
+    }
+
+    /** Fields go by their numbers, however they stand in the text. */
+    private static void notInOrder() {
+        c = new Check();
+        c.schema(0, "record N { } record R { int c @ 9; one o { int b @ 7; text a @ 1; N n @ 4; R q @ 10; } maybe int d @ 3; many int e @ 8; R r @ 2; text t @ 6; map<int, int> m @ 5; }");
+        String all = "R{r:{},d:3,n:{},m:<5:5>,t:\"6\",e:[8],c:9}";
+        c.read(0, 0, "R{c:9,n:{},d:3,e:[8],r:{},t:\"6\",m:<5:5>}");
+        c.printed("by rising numbers", 0, all);
+        for (String[] p : new String[][] {{"c", ",c:9"}, {"n", "n:{},"}, {"d", "d:3,"}, {"e", "e:[8],"}, {"r", "r:{},"}, {"t", "t:\"6\","}, {"m", "m:<5:5>,"}}) {
+            c.house.copy(0, 1);
+            Check.due("remove " + p[0], c.remove(1, p[0]) >= 0 ? 1 : 0, 1);
+            c.printed("without " + p[0], 1, all.replace(p[1], ""));
+        }
+        String[][] puts = {{"b = 7", "b:7"}, {"a = \"1\"", "a:\"1\""}, {"n = {}", "n:{}"}, {"q.d = 0", "q:{d:0}"}, {"a = \"\"", "a:\"\""}, {"q = {}", "q:{}"}, {"b = 0", "b:0"}};
+        c.read(0, 0, "R{r:{},m:<5:5>,c:9}");
+        for (String[] p : puts) {
+            Check.due(p[0], c.put(0, p[0]) >= 4 ? 1 : 0, 1);
+            char name = p[1].charAt(0);
+            String due = name == 'a' ? "R{#,r:{},m:<5:5>,c:9}" : name == 'n' ? "R{r:{},#,m:<5:5>,c:9}" : name == 'b' ? "R{r:{},m:<5:5>,#,c:9}" : "R{r:{},m:<5:5>,c:9,#}";
+            c.printed("behind " + p[0], 0, due.replace("#", p[1]));
+        }
+        // the others of the one go in a STREAM, too
+        c.load(2, "4809 3807 1200 0a0131 2200 5200 3806");
+        Check.due("decode", c.house.decode(0, 1, 0, 2, 1), 3);
+        c.printed("the last of the one", 1, "R{r:{},b:6,c:9}");
+        Check.due("differ", c.house.differ(0, 1), 2);
+        c.house.path(0, 3);
+        c.row("m", 3, "m");
+        c.house.path(1, 3);
+        c.row("b", 3, "b");
     }
 
     /** As many parts as THE TAPE has room for, of a message that is full. */

@@ -246,6 +246,10 @@ public final class Edges08Judge {
         judge(STREAM, one, "maybe int a @ 7; maybe int b @ 6;", A, 0);
         judge(STREAM, one, "one o { int a @ 7; long b @ 6; int c @ 5; }", W, 6);
         judge(STREAM, "one o { int a @ 7; int b @ 6; } maybe int c @ 5;", "one o { int a @ 7; int b @ 6; int c @ 5; }", L, 5);
+        // what NEW has beside the one does not count
+        judge(STREAM, "maybe int a @ 7; int b @ 6;", "one o { int a @ 7; } int b @ 6;", A, 0);
+        judge(STREAM, "maybe int a @ 7; maybe int b @ 6; int c @ 5;", "one o { int a @ 7; } one p { int b @ 6; } int c @ 5;", A, 0);
+        judge(STREAM, "one o { int a @ 7; int b @ 6; } int c @ 5;", "one o { int a @ 7; int b @ 6; } int c @ 5;", A, 0);
         judge(STREAM, "N a @ 7; maybe int b @ 6;", "one o { N a @ 7; int b @ 6; }", L, 6);
         judge(STREAM, "N a @ 7;", "one o { N a @ 7; int b @ 6; }", A, 0);
         // MANY of OLD as one that is in a one
@@ -380,6 +384,9 @@ public final class Edges08Judge {
         judge(SLOTTED, "int a @ 5;", "one o { int a @ 5; }", B, 5);
         judge(SLOTTED, "N a @ 5;", "one o { N a @ 5; }", B, 5);
         judge(SLOTTED, "one o { N a @ 5; }", "N a @ 5;", B, 5);
+        // FLAG and TAG, and pointers, at the same places
+        judge(SLOTTED, "one o { text a @ 5; }", "maybe text a @ 5;", B, 5);
+        judge(SLOTTED, "maybe text a @ 5;", "one o { text a @ 5; }", B, 5);
         judge(SLOTTED, "one o { int a @ 5; }", "bool b @ 4; one o { int a @ 5; }", B, 5);
         // the TAG elsewhere, though the pointer is the same
         judge(SLOTTED, "one o { text a @ 5; }", "bool b @ 4; one o { text a @ 5; }", B, 5);

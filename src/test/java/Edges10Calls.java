@@ -30,6 +30,7 @@ public final class Edges10Calls {
         partsTwice();
         partsByClient();
         lastOfAll();
+        recordsOfCalls();
         remembersSix();
         remembersBytes();
         remembersOldest();
@@ -599,6 +600,36 @@ public final class Edges10Calls {
         x.deliver(0);
         x.deliver(0);
         Check.due("another service's NAME", x.outcome(1, 0, 1), 1);
+    }
+
+    /** Each call has records of its own, whatever the time is. */
+    private static void recordsOfCalls() {
+        c = new Check();
+        x = c.house;
+        c.schema(0, "record A { int x @ 1; } record B { int y @ 1; } record C { int z @ 1; } record D { int w @ 1; } service S { cell n; call p (A) B @ 5 { out.y = in.x + 1; } call q (B) C @ 4 { out.z = in.y + 2; } call r (C) D @ 3 { out.w = in.z + 3; } call s (D) A @ 2 { out.x = in.w + 4; } }");
+        x.server(0, 0, 1);
+        x.client(0, 0, 0);
+        String[] names = {"A{x:", "B{y:", "C{z:", "D{w:"};
+        for (int m = 0; m < 4; m++) {
+            c.read(0, m, names[m] + "10}");
+        }
+        x.tick(2);
+        for (int j = 0; j < 4; j++) {
+            for (int m = 0; m < 4; m++) {
+                Check.due("call " + j + " with message " + m, x.invoke(0, j, m), j == m ? j : Check.NO);
+            }
+            x.tick(1);
+        }
+        for (int i = 0; i < 8; i++) {
+            x.deliver(0);
+        }
+        for (int j = 0; j < 4; j++) {
+            Check.due("its place", x.outcome(0, j, 3), j);
+            Check.due("sent once", x.outcome(0, j, 2), 1);
+            Check.due("take", x.take(0, j, 5), 1);
+            c.printed("the answer", 5, names[(j + 1) % 4] + (11 + j) + "}");
+            Check.due("its record", x.told(5, 1), (j + 1) % 4);
+        }
     }
 
     private static void remembersSix() {

@@ -37,6 +37,7 @@ public final class EdgesRefused {
         mergesFull();
         faultsOfTexts();
         faultsOfPaths();
+        gone();
         withoutAnything();
         Check.end();
     }
@@ -671,6 +672,47 @@ public final class EdgesRefused {
             fault("decode", x.decode(0, 1, format, 1, 4));
         }
         endFaults("decode", place);
+    }
+
+    private static void none(int m) {
+        refused("told", NO, () -> x.told(m, 0));
+        refused("print", NO, () -> x.print(m, 0));
+        refused("copy", NO, () -> x.copy(m, 5));
+        refused("drop", NO, () -> x.drop(m));
+        refused("same", NO, () -> x.same(m, 3));
+        refused("same", NO, () -> x.same(3, m));
+        refused("encode", NO, () -> x.encode(m, 0, 0));
+        refused("merge", NO, () -> x.merge(m, 3));
+        refused("merge", NO, () -> x.merge(3, m));
+        refused("merge", NO, () -> x.merge(m, m));
+        refused("differ", NO, () -> x.differ(m, 3));
+        refused("differ", NO, () -> x.differ(3, m));
+        refused("ask", NO, () -> x.ask(m, 0));
+        refused("put", NO, () -> x.put(m));
+        refused("remove", NO, () -> x.remove(m));
+        refused("invoke", NO, () -> x.invoke(0, 0, m));
+    }
+
+    /** A message that was there, and is not now, is none. */
+    private static void gone() {
+        begin();
+        x.drop(0);
+        before = told();
+        none(0);
+        end("a message that was dropped");
+        // with its schema
+        c = new Check();
+        x = c.house;
+        c.schema(0, SCHEMA);
+        c.schema(1, SCHEMA);
+        c.read(1, 0, "A{x:1}");
+        c.read(0, 3, "A{x:1}");
+        x.server(0, 0, 0);
+        x.client(0, 0, 0);
+        c.schema(1, SCHEMA);
+        before = told();
+        none(0);
+        end("a message whose schema is another one now");
     }
 
     /** A new object has nothing: NO, or BAD where that is asked first. */
