@@ -111,7 +111,19 @@ public final class Edges06Layouts {
 
     /** Unknown fields are not WRITTEN but in a STREAM. */
     private static void withoutUnknown() {
-        begin("int i @ 1; R r @ 2; many R l @ 3; map<int, R> m @ 4; text t @ 5;");
+        for (String parts : new String[] {"int i @ 1; R r @ 2; many R l @ 3; map<int, R> m @ 4; text t @ 5;",
+            "R r @ 2; int i @ 1; text t @ 5; many R l @ 3; map<int, R> m @ 4;", "text t @ 5; map<int, R> m @ 4; many R l @ 3; R r @ 2; int i @ 1;"}) {
+            withoutUnknown(parts);
+        }
+        begin("");
+        c.load(0, "f80c01 fa0c00");
+        c.house.decode(0, 2, 0, 0, 0);
+        Check.due("a record without words", c.house.encode(0, 2, 3), 8);
+        c.bytes("at -1", 3, row(rec(-1, 0, 0)));
+    }
+
+    private static void withoutUnknown(String parts) {
+        begin(parts);
         c.load(0, "f80c01 0805 1207 0806 fa0c026162 1a03f80c01 220a 0803 1206 f80c05 f80c06 2a0161 f90c0102030405060708");
         Check.due("with six unknown fields", c.house.decode(0, 2, 0, 0, 0) > 0 ? c.house.told(0, 5) : 0, 6);
         c.printed("without them", 0, "R{i:5,r:{i:6},l:[{}],m:<3:{}>,t:\"a\"}");
@@ -122,11 +134,6 @@ public final class Edges06Layouts {
             c.house.decode(0, 2, format, 2, 4);
             Check.due("READ, they are gone", c.house.same(1, 4), 1);
         }
-        begin("");
-        c.load(0, "f80c01 fa0c00");
-        c.house.decode(0, 2, 0, 0, 0);
-        Check.due("a record without words", c.house.encode(0, 2, 3), 8);
-        c.bytes("at -1", 3, row(rec(-1, 0, 0)));
     }
 
     private static void flags() {

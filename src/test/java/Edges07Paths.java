@@ -687,6 +687,12 @@ public final class Edges07Paths {
         c.load(2, "4809 3807 1200 0a0131 2200 5200 3806");
         Check.due("decode", c.house.decode(0, 1, 0, 2, 1), 3);
         c.printed("the last of the one", 1, "R{r:{},b:6,c:9}");
+        c.load(2, "4809 320136 4800 1807 320164 3806 4805 320135");
+        Check.due("DEFAULTS that come later", c.house.decode(0, 1, 0, 2, 2), 4);
+        c.printed("the later ones", 2, "R{d:7,t:\"5\",b:6,c:5}");
+        c.load(2, "4809 320136 1807 4800 3200");
+        Check.due("DEFAULTS that come later", c.house.decode(0, 1, 0, 2, 2), 1);
+        c.printed("alone", 2, "R{d:7}");
         Check.due("differ", c.house.differ(0, 1), 2);
         c.house.path(0, 3);
         c.row("m", 3, "m");
