@@ -2511,7 +2511,7 @@ public final class WireHouse {
 
         int count(int node) {
             int count = 0;
-            for (int n = nodes.at(node, HEAD); n != 0; n = nodes.at(n, NEXT)) {
+            for (int n = first(node), turn = 0; n != 0 && turn < TURNS; n = next(n), turn++) {
                 count++;
             }
             return count;
@@ -2527,7 +2527,7 @@ public final class WireHouse {
 
         int child(int rec, int tag) {
             int n = nodes.at(rec, HEAD);
-            while (n != 0 && nodes.at(n, TAG) < tag) {
+            for (int turn = 0; turn < TURNS && n != 0 && nodes.at(n, TAG) < tag; turn++) {
                 n = nodes.at(n, NEXT);
             }
             return n != 0 && nodes.at(n, TAG) == tag ? n : 0;
@@ -2542,7 +2542,7 @@ public final class WireHouse {
         private int enter(int rec, int tag) {
             int before = 0;
             int n = nodes.at(rec, HEAD);
-            while (n != 0 && nodes.at(n, TAG) < tag) {
+            for (int turn = 0; turn < TURNS && n != 0 && nodes.at(n, TAG) < tag; turn++) {
                 before = n;
                 n = nodes.at(n, NEXT);
             }
@@ -2563,7 +2563,7 @@ public final class WireHouse {
         void leave(int rec, int tag) {
             int before = 0;
             int n = nodes.at(rec, HEAD);
-            while (n != 0 && nodes.at(n, TAG) < tag) {
+            for (int turn = 0; turn < TURNS && n != 0 && nodes.at(n, TAG) < tag; turn++) {
                 before = n;
                 n = nodes.at(n, NEXT);
             }
@@ -2580,7 +2580,7 @@ public final class WireHouse {
         void unlink(int parent, int node) {
             int before = 0;
             int n = nodes.at(parent, HEAD);
-            while (n != 0 && n != node) {
+            for (int turn = 0; turn < TURNS && n != 0 && n != node; turn++) {
                 before = n;
                 n = nodes.at(n, NEXT);
             }
@@ -2690,7 +2690,7 @@ public final class WireHouse {
             int before = 0;
             int n = nodes.at(map, HEAD);
             int by = n == 0 ? 1 : compareKey(n, keyKind, keyNode);
-            while (n != 0 && by < 0) {
+            for (int turn = 0; turn < TURNS && n != 0 && by < 0; turn++) {
                 before = n;
                 n = nodes.at(n, NEXT);
                 by = n == 0 ? 1 : compareKey(n, keyKind, keyNode);
@@ -2733,20 +2733,20 @@ public final class WireHouse {
             bytes = 0;
             depth = 1;
             strangers = 0;
-            tallyBelow(ROOT, 1, 0);
+            tallyBelow(this, ROOT, 1, 0);
         }
 
-        private void tallyBelow(int node, int deep, int level) {
-            boolean map = nodes.at(node, SHAPE) == A_MAP;
-            depth = Math.max(depth, deep);
-            for (int n = nodes.at(node, HEAD); n != 0; n = nodes.at(n, NEXT)) {
-                int shape = nodes.at(n, SHAPE);
-                values += map ? 2 : 1;
-                bytes += map ? nodes.at(n, KEY_LEN) : 0;
-                bytes += shape == A_STRING || shape == A_STRANGER ? nodes.at(n, LEN) : 0;
-                strangers += shape == A_STRANGER ? 1 : 0;
+        private static void tallyBelow(Tree tree, int node, int deep, int level) {
+            boolean map = tree.nodes.at(node, SHAPE) == A_MAP;
+            tree.depth = Math.max(tree.depth, deep);
+            for (int n = tree.first(node), turn = 0; n != 0 && turn < TURNS; n = tree.next(n), turn++) {
+                int shape = tree.nodes.at(n, SHAPE);
+                tree.values += map ? 2 : 1;
+                tree.bytes += map ? tree.nodes.at(n, KEY_LEN) : 0;
+                tree.bytes += shape == A_STRING || shape == A_STRANGER ? tree.nodes.at(n, LEN) : 0;
+                tree.strangers += shape == A_STRANGER ? 1 : 0;
                 if (level < LEVELS && shape >= A_RECORD && shape <= A_MAP) {
-                    tallyBelow(n, shape == A_RECORD ? deep + 1 : deep, level + 1);
+                    tallyBelow(tree, n, shape == A_RECORD ? deep + 1 : deep, level + 1);
                 }
             }
         }
@@ -2757,7 +2757,7 @@ public final class WireHouse {
 
         void become(Tree from) {
             begin(from.schema, from.type);
-            branch(from, ROOT, ROOT, 0);
+            branch(from, ROOT, this, ROOT, 0);
             there = true;
             values = from.values;
             bytes = from.bytes;
@@ -2765,19 +2765,19 @@ public final class WireHouse {
             strangers = from.strangers;
         }
 
-        private void branch(Tree from, int source, int target, int level) {
-            for (int n = from.first(source); n != 0; n = from.next(n)) {
-                int copy = append(target);
-                nodes.set(copy, TAG, from.nodes.num(n, TAG));
-                nodes.set(copy, SHAPE, from.nodes.num(n, SHAPE));
-                nodes.set(copy, NUM, from.nodes.num(n, NUM));
-                nodes.set(copy, KEY, from.nodes.num(n, KEY));
-                nodes.set(copy, KEY_OFF, pool.n);
-                nodes.set(copy, KEY_LEN, from.nodes.num(n, KEY_LEN));
-                pool.addAll(from.pool, from.nodes.at(n, KEY_OFF), from.nodes.at(n, KEY_LEN));
-                setString(copy, from.pool, from.nodes.at(n, OFF), from.nodes.at(n, LEN));
+        private static void branch(Tree from, int source, Tree to, int target, int level) {
+            for (int n = from.first(source), turn = 0; n != 0 && turn < TURNS; n = from.next(n), turn++) {
+                int copy = to.append(target);
+                to.nodes.set(copy, TAG, from.nodes.num(n, TAG));
+                to.nodes.set(copy, SHAPE, from.nodes.num(n, SHAPE));
+                to.nodes.set(copy, NUM, from.nodes.num(n, NUM));
+                to.nodes.set(copy, KEY, from.nodes.num(n, KEY));
+                to.nodes.set(copy, KEY_OFF, to.pool.n);
+                to.nodes.set(copy, KEY_LEN, from.nodes.num(n, KEY_LEN));
+                to.pool.addAll(from.pool, from.nodes.at(n, KEY_OFF), from.nodes.at(n, KEY_LEN));
+                to.setString(copy, from.pool, from.nodes.at(n, OFF), from.nodes.at(n, LEN));
                 if (level < LEVELS && from.first(n) != 0) {
-                    branch(from, n, copy, level + 1);
+                    branch(from, n, to, copy, level + 1);
                 }
             }
         }
@@ -2786,7 +2786,7 @@ public final class WireHouse {
         private static boolean isSameBelow(Tree a, int x, Tree b, int y, boolean strangers, int level) {
             int n = a.nodes.at(x, HEAD);
             int m = b.nodes.at(y, HEAD);
-            while (n != 0 && m != 0) {
+            for (int turn = 0; turn < TURNS && n != 0 && m != 0; turn++) {
                 boolean ends = !strangers && a.nodes.at(n, SHAPE) == A_STRANGER;
                 if (ends && b.nodes.at(m, SHAPE) == A_STRANGER) {
                     return true;
@@ -3255,7 +3255,7 @@ public final class WireHouse {
 
         private void printRecord(int rec, int k, int depth) {
             char before = '{';
-            for (int n = tree.first(rec); n != 0; n = tree.next(n)) {
+            for (int n = tree.first(rec), turn = 0; n != 0 && turn < TURNS; n = tree.next(n), turn++) {
                 if (tree.shape(n) != A_STRANGER) {
                     int j = sc.fields.at(k, tree.nodes.at(n, TAG), F_ORDER);
                     out.add(before);
@@ -3280,7 +3280,7 @@ public final class WireHouse {
                 return;
             }
             char before = mode == MANY ? '[' : '<';
-            for (int n = tree.first(node); n != 0; n = tree.next(n)) {
+            for (int n = tree.first(node), turn = 0; n != 0 && turn < TURNS; n = tree.next(n), turn++) {
                 out.add(before);
                 if (mode == MAP) {
                     printKey(n, sc.fields.at(k, j, F_KEY));
@@ -3604,7 +3604,7 @@ public final class WireHouse {
         }
 
         private void streamOut(int rec, int k, int depth) {
-            for (int n = tree.first(rec); n != 0; n = tree.next(n)) {
+            for (int n = tree.first(rec), turn = 0; n != 0 && turn < TURNS; n = tree.next(n), turn++) {
                 int j = sc.fields.at(k, tree.nodes.at(n, TAG), F_ORDER);
                 int mode = sc.fields.at(k, j, F_MODE);
                 if (tree.shape(n) == A_STRANGER) {
@@ -3652,20 +3652,20 @@ public final class WireHouse {
             if (isNumber(kind)) {
                 row.addVarint(number << 3 | 2);
                 int start = row.n;
-                for (int n = tree.first(list); n != 0; n = tree.next(n)) {
+                for (int n = tree.first(list), turn = 0; n != 0 && turn < TURNS; n = tree.next(n), turn++) {
                     numberOut(tree.nodes.num(n, NUM), kind);
                 }
                 row.addLengthAhead(start);
                 return;
             }
-            for (int n = tree.first(list); n != 0; n = tree.next(n)) {
+            for (int n = tree.first(list), turn = 0; n != 0 && turn < TURNS; n = tree.next(n), turn++) {
                 keyedOut(n, number, k, j, depth);
             }
         }
 
         private void entriesOut(int map, int k, int j, int depth) {
             int keyKind = sc.fields.at(k, j, F_KEY);
-            for (int n = tree.first(map); n != 0; n = tree.next(n)) {
+            for (int n = tree.first(map), turn = 0; n != 0 && turn < TURNS; n = tree.next(n), turn++) {
                 row.addVarint(sc.fields.num(k, j, F_NUMBER) << 3 | 2);
                 int start = row.n;
                 row.addVarint(8 + wireOf(keyKind));
@@ -3917,7 +3917,7 @@ public final class WireHouse {
         private void linearItemsOut(int list, int k, int j, int depth) {
             int keyKind = sc.fields.at(k, j, F_KEY);
             row.addBig(tree.count(list), 4);
-            for (int n = tree.first(list); n != 0; n = tree.next(n)) {
+            for (int n = tree.first(list), turn = 0; n != 0 && turn < TURNS; n = tree.next(n), turn++) {
                 if (sc.fields.at(k, j, F_MODE) == MAP) {
                     if (keyKind == TEXT) {
                         stringOut(tree.pool, tree.nodes.at(n, KEY_OFF), tree.nodes.at(n, KEY_LEN));
@@ -4060,7 +4060,7 @@ public final class WireHouse {
         }
 
         private void dataOut(int to, int node, int k) {
-            for (int n = tree.first(node); n != 0; n = tree.next(n)) {
+            for (int n = tree.first(node), turn = 0; n != 0 && turn < TURNS; n = tree.next(n), turn++) {
                 if (tree.shape(n) == A_STRANGER) {
                     return;
                 }
@@ -4082,8 +4082,8 @@ public final class WireHouse {
 
         private void pointersOut(int to, int node, int k, int depth) {
             int from = to + sc.types.at(k, TY_DATA);
-            for (int p = 0; p < sc.types.at(k, TY_POINTERS); p++) {
-                for (int n = tree.first(node); n != 0; n = tree.next(n)) {
+            for (int p = 0; p < sc.types.at(k, TY_POINTERS) && depth <= MOST_DEEP; p++) {
+                for (int n = tree.first(node), turn = 0; n != 0 && turn < TURNS; n = tree.next(n), turn++) {
                     int j = sc.fields.at(k, tree.nodes.at(n, TAG), F_ORDER);
                     if (tree.shape(n) != A_STRANGER && sc.fields.at(k, j, F_POINTER) == p) {
                         objectOut(from + p, n, k, j, depth);
@@ -4136,7 +4136,7 @@ public final class WireHouse {
             int to = claim(wordsOf(sort, size));
             putBits(at, 0, 64, pointerWord(1, at, to, sort | (long) size << 3));
             int i = 0;
-            for (int n = tree.first(list); n != 0; n = tree.next(n)) {
+            for (int n = tree.first(list), turn = 0; n != 0 && turn < TURNS; n = tree.next(n), turn++) {
                 if (isNumber(kind)) {
                     putBits(to, i * bitsOf(kind), bitsOf(kind), tree.nodes.num(n, NUM));
                 } else {
@@ -4159,12 +4159,12 @@ public final class WireHouse {
             int each = dataWords + sc.types.at(type, TY_POINTERS);
             int from = recordListOut(at, size, dataWords, each - dataWords);
             int to = from;
-            for (int n = tree.first(list); n != 0; n = tree.next(n)) {
+            for (int n = tree.first(list), turn = 0; n != 0 && turn < TURNS; n = tree.next(n), turn++) {
                 dataOut(to, n, type);
                 to += each;
             }
             to = from;
-            for (int n = tree.first(list); n != 0; n = tree.next(n)) {
+            for (int n = tree.first(list), turn = 0; n != 0 && turn < TURNS; n = tree.next(n), turn++) {
                 pointersOut(to, n, type, depth + 1);
                 to += each;
             }
@@ -4177,7 +4177,7 @@ public final class WireHouse {
             int each = dataWords + entryPointers(keyKind, kind);
             int from = recordListOut(at, tree.count(map), dataWords, each - dataWords);
             int to = from;
-            for (int n = tree.first(map); n != 0; n = tree.next(n)) {
+            for (int n = tree.first(map), turn = 0; n != 0 && turn < TURNS; n = tree.next(n), turn++) {
                 if (isNumber(keyKind)) {
                     putBits(to, 0, bitsOf(keyKind), tree.nodes.num(n, KEY));
                 }
@@ -4187,7 +4187,7 @@ public final class WireHouse {
                 to += each;
             }
             to = from + dataWords;
-            for (int n = tree.first(map); n != 0; n = tree.next(n)) {
+            for (int n = tree.first(map), turn = 0; n != 0 && turn < TURNS; n = tree.next(n), turn++) {
                 int len = tree.nodes.at(n, KEY_LEN);
                 if (keyKind == TEXT && len > 0) {
                     stringOut(to, tree.nodes.at(n, KEY_OFF), len, TEXT);
@@ -4690,12 +4690,12 @@ public final class WireHouse {
         /** Behind a field or a one of a record: where the next part begins. */
         private static int behindPart(Schema sc, int k, int j) {
             int one = sc.fields.at(k, j, F_ONE);
-            return one < 0 ? j + 1 : j + Math.max(1, sc.ones.at(k, one, O_COUNT));
+            return one < 0 ? j + 1 : j + sc.ones.at(k, one, O_COUNT);
         }
 
         private static int partCount(Schema sc, int k) {
             int count = 0;
-            for (int j = 0; j < sc.fieldCount(k); j = behindPart(sc, k, j)) {
+            for (int j = 0; j < sc.fieldCount(k); j = Math.max(j + 1, behindPart(sc, k, j))) {
                 count++;
             }
             return count;
@@ -4708,7 +4708,7 @@ public final class WireHouse {
             }
             int worst = ALIKE;
             int g = 0;
-            for (int f = 0; f < old.fieldCount(a); f = behindPart(old, a, f)) {
+            for (int f = 0; f < old.fieldCount(a); f = Math.max(f + 1, behindPart(old, a, f))) {
                 int one = old.fields.at(a, f, F_ONE);
                 int least = one < 0 ? old.fields.at(a, f, F_NUMBER) : old.ones.at(a, one, O_LEAST);
                 int level = linearPart(a, f, b, g);
@@ -4796,18 +4796,23 @@ public final class WireHouse {
                 int j = old.fields.at(k, rank, F_ORDER);
                 int length = way.n;
                 way.addAll(old.text, old.fields.at(k, j, F_NAME), old.fields.at(k, j, F_NAME_LEN));
-                if (n != 0 && m != 0 && old.isRecordField(k, j) && depth < MOST_DEEP) {
-                    way.add('.');
-                    differBelow(n, m, old.fields.at(k, j, F_TYPE), depth + 1);
-                } else if (n != 0 && m != 0) {
-                    if (!Tree.isSameNode(one, n, two, m)
-                            || !Tree.isSameBelow(one, n, two, m, false, 0)) {
-                        keepWay();
-                    }
-                } else if (n != m) {
+                differAt(n, m, k, j, depth);
+                way.n = length;
+            }
+        }
+
+        /** A field whose nodes are n and m (0: it is not SET there). */
+        private void differAt(int n, int m, int k, int j, int depth) {
+            if (n != 0 && m != 0 && old.isRecordField(k, j) && depth < MOST_DEEP) {
+                way.add('.');
+                differBelow(n, m, old.fields.at(k, j, F_TYPE), depth + 1);
+            } else if (n != 0 && m != 0) {
+                if (!Tree.isSameNode(one, n, two, m)
+                        || !Tree.isSameBelow(one, n, two, m, false, 0)) {
                     keepWay();
                 }
-                way.n = length;
+            } else if (n != m) {
+                keepWay();
             }
         }
 
